@@ -32,11 +32,16 @@ public final class SignalTheatre {
     private final Stage stage;
 
     public SignalTheatre() {
+        Tokens tokens = new Tokens();
+        Faults found = new Faults(tokens);
+        Maker maker = new Maker(tokens, found, new Worth());
+        Reader reader = new Reader(tokens, found, maker);
+        Worth worth = new Worth();
         circuit = new Circuit();
         spare = new Circuit();
-        faults = new Faults();
-        builder = new Builder(faults);
-        stage = new Stage();
+        faults = found;
+        builder = new Builder(tokens, found, maker, reader);
+        stage = new Stage(new Agenda(), worth, new Book(worth));
     }
 
     public int feed(int a, int b, int c, int d, int e) throws IndexOutOfBoundsException {
@@ -70,8 +75,14 @@ public final class SignalTheatre {
         int size = length;
         length = 0;
         spare.clear(input, size);
-        builder.check(spare, size);
+        builder.open(spare, size);
+        for (int k = 0; k < MOST_INPUT && builder.isOpen(); k++) {
+            builder.item();
+        }
         builder.flatten();
+        for (int k = 0; k < 2 * MOST_TOKENS && builder.isOpen(); k++) {
+            builder.item();
+        }
         Circuit made = spare;
         spare = circuit;
         circuit = made;
@@ -177,26 +188,33 @@ public final class SignalTheatre {
 
     /** The latest FAULT, and the one with the least PLACE found so far in what is being looked at. */
     private static final class Faults {
+        /** Braces that are too wide: 4, unless something else is wrong in them. */
+        static final int WIDE = 7;
+
+        private final Tokens tokens;
         int number;
         int place = -1;
-        int foundNumber;
-        int foundPlace;
+        private int foundNumber;
+        private int foundPlace;
         /** Whether more than too wide braces was found: then widths are not to be trusted. */
         boolean hard;
+        /** Whether others than those of the form are looked for. */
+        boolean on;
 
-        void note(int kind, int where) {
-            hard = true;
-            keep(kind, where);
+        Faults(Tokens someTokens) {
+            tokens = someTokens;
         }
 
-        void noteWide(int where) {
-            keep(4, where);
-        }
-
-        private void keep(int kind, int where) {
+        void note(int kind, int token) {
+            if (!on || kind == WIDE && hard) {
+                return;
+            }
+            hard = hard || kind != WIDE;
+            int found = kind == WIDE ? 4 : kind;
+            int where = tokens.place[token];
             boolean first = foundNumber == 0 || where < foundPlace;
-            if (first || where == foundPlace && kind < foundNumber) {
-                foundNumber = kind;
+            if (first || where == foundPlace && found < foundNumber) {
+                foundNumber = found;
                 foundPlace = where;
             }
         }
@@ -214,14 +232,13 @@ public final class SignalTheatre {
         void refuse(int kind, int where) {
             number = kind;
             place = where;
-            forget();
             throw new IllegalStateException();
         }
 
         void forget() {
             foundNumber = 0;
-            foundPlace = 0;
             hard = false;
+            on = false;
         }
     }
 
@@ -306,7 +323,7 @@ public final class SignalTheatre {
         int length;
         final int[] kind = new int[MOST_INPUT + 1];
         final int[] place = new int[MOST_INPUT + 1];
-        /** Of a NAME its number; of a { whether copies are made in it. */
+        /** Of a NAME or NUMBER which one it is; of a { whether copies are made in it. */
         final int[] info = new int[MOST_INPUT + 1];
         int size;
         private final int[] nameHead = new int[HEADS];
@@ -314,17 +331,23 @@ public final class SignalTheatre {
         private final int[] namePlace = new int[MOST_NAMES];
         final int[] nameLength = new int[MOST_NAMES];
         int names;
-        /** The NUMBER that was read last. */
-        long ones;
-        long unknown;
-        int width;
-        boolean signed;
+        /** NUMBERS: their bits, and their shapes. */
+        final long[] numberOnes = new long[MOST_NAMES];
+        final long[] numberUnknown = new long[MOST_NAMES];
+        final int[] numberShape = new int[MOST_NAMES];
+        private int numbers;
+        /** The NUMBER that is being read. */
+        private long ones;
+        private long unknown;
+        private int width;
+        private boolean signed;
 
         void cut(byte[] bytes, int bytesThere) {
             text = bytes;
             length = bytesThere;
             size = 0;
             names = 0;
+            numbers = 0;
             Arrays.fill(nameHead, -1);
             int at = skipped(0);
             for (int k = 0; k < MOST_INPUT && at >= 0 && at < length; k++) {
@@ -391,7 +414,7 @@ public final class SignalTheatre {
             if (isDigit(c) || c == '\'') {
                 int behind = number(at);
                 if (behind >= 0) {
-                    add(NUMBER, at, 0);
+                    addNumber(at);
                 }
                 return behind;
             }
@@ -399,6 +422,16 @@ public final class SignalTheatre {
                 return system(at);
             }
             return c == '"' ? string(at) : sign(at);
+        }
+
+        private void addNumber(int at) {
+            if (numbers < MOST_NAMES) {
+                numberOnes[numbers] = ones;
+                numberUnknown[numbers] = unknown;
+                numberShape[numbers] = signed ? width | Code.SIGNED : width;
+                add(NUMBER, at, numbers);
+                numbers++;
+            }
         }
 
         private static boolean isDigit(int c) {
@@ -533,7 +566,7 @@ public final class SignalTheatre {
         }
 
         /** Reads the NUMBER at a place; answers the place behind it, or ~ of the wrong one. */
-        int number(int from) {
+        private int number(int from) {
             int at = from;
             long digits = 0;
             while (at < length && (isDigit(text[at]) || at > from && text[at] == '_')) {
@@ -592,7 +625,7 @@ public final class SignalTheatre {
             int at = from;
             ones = 0;
             while (at < length) {
-                int digit = digit(lower(byteAt(at)), each);
+                int digit = digitOf(lower(byteAt(at)), each);
                 if (digit >= 0) {
                     highest = got == 0 ? digit : highest;
                     got += each;
@@ -615,14 +648,14 @@ public final class SignalTheatre {
             return at;
         }
 
-        private static int digit(int c, int each) {
+        private static int digitOf(int c, int each) {
             if (c == 'x') {
                 return DIGIT_X;
             }
             if (c == 'z' || c == '?') {
                 return DIGIT_Z;
             }
-            int digit = isDigit(c) ? c - '0' : c >= 'a' && c <= 'f' ? c - 'a' + 10 : -1;
+            int digit = c >= '0' && c <= '9' ? c - '0' : c >= 'a' && c <= 'f' ? c - 'a' + 10 : -1;
             return digit < 1 << each ? digit : -1;
         }
 
@@ -695,6 +728,15 @@ public final class SignalTheatre {
         /** The first of its drivers, -1: none; the others hang on it. */
         int driver;
 
+        void begin(int someSort, boolean isSigned) {
+            sort = someSort;
+            signed = isSigned;
+            width = 1;
+            low = 0;
+            words = 0;
+            port = NO_PORT;
+        }
+
         void become(Signal other) {
             width = other.width;
             signed = other.signed;
@@ -719,18 +761,20 @@ public final class SignalTheatre {
      * its CONTEXT by plain loops however long it is.
      */
     private static final class Code {
-        /** A shape is a WIDTH, and this if it is signed. */
-        static final int SIGNED = 128;
+        /** A shape is a WIDTH, and SIGNED if it is; OPEN marks what a CONTEXT goes into. */
         static final int WIDTH = 127;
+        static final int SIGNED = 128;
+        static final int OPEN = 256;
+        static final int SHAPE = 255;
         // Operators between operands bear the kind of their TOKEN, those before one this more.
         static final int UNARY = 256;
         static final int CONSTANT = 512;
         static final int WHOLE = 513;
-        static final int BIT = 514;
-        static final int PART = 515;
-        static final int WORD = 516;
-        static final int CONSTANT_BIT = 517;
-        static final int NOW = 518;
+        static final int PART = 514;
+        static final int NOW = 515;
+        static final int BIT = 516;
+        static final int WORD = 517;
+        static final int CONSTANT_BIT = 518;
         static final int FIRST = 519;
         static final int JOIN = 520;
         static final int COPIES = 521;
@@ -766,6 +810,7 @@ public final class SignalTheatre {
         static final int MOST_COUNTERS = MOST_TOKENS / 5;
 
         final int[] op = new int[MOST_NODES];
+        /** What is read; of an operator between operands its level. */
         final int[] arg = new int[MOST_NODES];
         /** Where the operands of a node begin. */
         final int[] first = new int[MOST_NODES];
@@ -858,13 +903,19 @@ public final class SignalTheatre {
             }
         }
 
+        // Levels of operators between operands that are worked out alike.
+        static final int JOINING = 2;
+        static final int COMPARING = 6;
+        static final int ORDERING = 7;
+        static final int SHIFTING = 8;
+
         /** How tightly an operator between operands binds, 1 to 10; 0: it is none. */
         static int level(int kind) {
             switch (kind) {
                 case Tokens.EITHER:
                     return 1;
                 case Tokens.BOTH:
-                    return 2;
+                    return JOINING;
                 case '|':
                     return 3;
                 case '^':
@@ -876,17 +927,17 @@ public final class SignalTheatre {
                 case Tokens.UNEQUAL:
                 case Tokens.SAME:
                 case Tokens.NOT_SAME:
-                    return 6;
+                    return COMPARING;
                 case '<':
                 case '>':
                 case Tokens.AT_MOST:
                 case Tokens.AT_LEAST:
-                    return 7;
+                    return ORDERING;
                 case Tokens.UP:
                 case Tokens.DOWN:
                 case Tokens.UP_SIGNED:
                 case Tokens.DOWN_SIGNED:
-                    return 8;
+                    return SHIFTING;
                 case '+':
                 case '-':
                     return 9;
@@ -906,7 +957,7 @@ public final class SignalTheatre {
 
         /** Gives an EXPR its CONTEXT: operators stand behind their operands, so from the end on. */
         void shape(int root, int shape) {
-            given[root] = shape;
+            given[root] = shape & SHAPE;
             for (int k = root; k >= first[root]; k--) {
                 if (first[k] < k) {
                     spread(k);
@@ -916,34 +967,24 @@ public final class SignalTheatre {
 
         private void spread(int k) {
             int last = k - 1;
-            int kind = op[k];
-            given[last] = own[last];
-            if (kind == '?') {
-                int middle = first[last] - 1;
-                int condition = first[middle] - 1;
-                given[last] = given[k];
-                given[middle] = given[k];
-                given[condition] = own[condition];
-            } else if (kind == JOIN) {
-                given[first[last] - 1] = own[first[last] - 1];
-            } else if (kind < UNARY) {
-                spreadToBoth(k, first[last] - 1, last);
-            } else if (kind == UNARY + '+' || kind == UNARY + '-' || kind == UNARY + '~') {
-                given[last] = given[k];
-            }
-        }
-
-        private void spreadToBoth(int k, int left, int right) {
-            int level = level(op[k]);
-            if (level <= 2) {
-                given[left] = own[left];
-            } else if (level == 6 || level == 7) {
-                int both = wider(own[left], own[right]);
-                given[left] = both;
-                given[right] = both;
-            } else {
-                given[left] = given[k];
-                given[right] = level == 8 ? own[right] : given[k];
+            int open = (own[k] & OPEN) != 0 ? given[k] : 0;
+            given[last] = open != 0 ? open : own[last] & SHAPE;
+            int before = first[last] - 1;
+            if (op[k] == '?') {
+                given[before] = open;
+                int condition = first[before] - 1;
+                given[condition] = own[condition] & SHAPE;
+            } else if (op[k] == JOIN) {
+                given[before] = own[before] & SHAPE;
+            } else if (op[k] < UNARY) {
+                given[before] = open != 0 ? open : own[before] & SHAPE;
+                if (arg[k] == COMPARING || arg[k] == ORDERING) {
+                    int both = wider(own[before], own[last]);
+                    given[before] = both;
+                    given[last] = both;
+                } else if (arg[k] == SHIFTING) {
+                    given[last] = own[last] & SHAPE;
+                }
             }
         }
     }
@@ -1109,7 +1150,7 @@ public final class SignalTheatre {
         /** DEPTH is at most 40, and no level of it leaves more than a dozen operands open. */
         private static final int MOST_OPEN = 1024;
         /** No number that a bit or a word can have. */
-        static final long NOWHERE = Long.MIN_VALUE;
+        private static final long NOWHERE = Long.MIN_VALUE;
 
         private final long[] ones = new long[MOST_OPEN];
         private final long[] unknown = new long[MOST_OPEN];
@@ -1117,23 +1158,39 @@ public final class SignalTheatre {
         private Circuit circuit;
         private Code code;
         long now;
+        /** What the node at hand is worth, before it is cut to its WIDTH. */
+        private long o;
+        private long u;
 
         void work(Circuit of, int root) {
             circuit = of;
             code = of.code;
             top = 0;
-            for (int k = code.first[root]; k <= root; k++) {
+            for (int k = code.first[root]; k <= root && top < MOST_OPEN; k++) {
                 int op = code.op[k];
-                if (op >= Code.CONSTANT) {
-                    special(k, op);
-                    widen(k);
+                if (op >= Code.FIRST) {
+                    join(k, op);
+                } else if (op >= Code.BIT) {
+                    pick(k, op);
+                } else if (op >= Code.CONSTANT) {
+                    read(k, op);
                 } else if (op >= Code.UNARY) {
                     unary(k, op - Code.UNARY);
                 } else if (op == '?') {
-                    choose(k);
+                    choose();
                 } else {
                     binary(k, op);
                 }
+                int have = ((code.own[k] & Code.OPEN) != 0 ? code.given[k] : code.own[k]) & Code.WIDTH;
+                int want = code.given[k] & Code.WIDTH;
+                if (want > have && (code.given[k] & Code.SIGNED) != 0) {
+                    o = o << 64 - have >> 64 - have;
+                    u = u << 64 - have >> 64 - have;
+                    have = want;
+                }
+                ones[top] = o & -1L >>> 64 - have;
+                unknown[top] = u & -1L >>> 64 - have;
+                top++;
             }
         }
 
@@ -1146,122 +1203,89 @@ public final class SignalTheatre {
         }
 
         boolean isTrue() {
-            return truth(0) == 1;
+            return (ones[0] & ~unknown[0]) != 0;
         }
 
-        /** The number that was worked out, with its sign if it has one; NOWHERE with x or z. */
-        long index(int root) {
-            return indexAt(0, code.given[root]);
-        }
-
-        private long indexAt(int at, int shape) {
+        /** The number of a shape that was worked out, as far as that; NOWHERE with x or z. */
+        long index(int at, int shape) {
+            int up = 64 - (shape & Code.WIDTH);
             if (unknown[at] != 0) {
                 return NOWHERE;
             }
             if ((shape & Code.SIGNED) != 0) {
-                return asSigned(ones[at], shape & Code.WIDTH);
+                return ones[at] << up >> up;
             }
             return ones[at] < 0 ? NOWHERE : ones[at];
         }
 
-        private void push(long someOnes, long someUnknown) {
-            if (top < MOST_OPEN) {
-                ones[top] = someOnes;
-                unknown[top] = someUnknown;
-                top++;
-            }
-        }
-
-        private void put(long someOnes, long someUnknown, long all) {
-            ones[top - 1] = someOnes & all;
-            unknown[top - 1] = someUnknown & all;
-        }
-
-        /** 0, 1, or x if it is 2, brought to the CONTEXT's WIDTH. */
-        private void putBit(int k, int bit) {
-            put(bit == 0 ? 0 : 1, bit == 2 ? 1 : 0, 1);
-            widen(k);
-        }
-
-        private void widen(int k) {
-            int have = code.own[k] & Code.WIDTH;
-            int want = code.given[k] & Code.WIDTH;
-            if (want > have && (code.given[k] & Code.SIGNED) != 0) {
-                put(asSigned(ones[top - 1], have), asSigned(unknown[top - 1], have), mask(want));
-            }
-        }
-
-        private void special(int k, int op) {
+        private void read(int k, int op) {
             int arg = code.arg[k];
+            int cell;
             switch (op) {
                 case Code.CONSTANT:
-                    push(code.ones[arg], code.unknown[arg]);
+                    o = code.ones[arg];
+                    u = code.unknown[arg];
                     break;
                 case Code.WHOLE:
-                    pushPart(circuit.signals[arg].cell, 0, mask(64));
+                    cell = circuit.signals[arg].cell;
+                    o = circuit.ones[cell];
+                    u = circuit.unknown[cell];
                     break;
                 case Code.PART:
-                    pushPart(circuit.signals[arg / 64].cell, arg % 64,
-                            mask(code.own[k] & Code.WIDTH));
-                    break;
-                case Code.NOW:
-                    push(now, 0);
-                    break;
-                case Code.BIT:
-                case Code.WORD:
-                    pick(circuit.signals[arg], takeIndex(k));
-                    break;
-                case Code.CONSTANT_BIT:
-                    int bit = within(takeIndex(k), 0, 32);
-                    push(bit < 0 ? 1 : code.ones[arg] >>> bit & 1, bit < 0 ? 1 : 0);
-                    break;
-                case Code.JOIN:
-                    top--;
-                    int shift = code.given[k - 1] & Code.WIDTH;
-                    put(ones[top - 1] << shift | ones[top], unknown[top - 1] << shift | unknown[top],
-                            mask(64));
-                    break;
-                case Code.COPIES:
-                    copy(arg, code.given[k - 1] & Code.WIDTH);
+                    cell = circuit.signals[arg / 64].cell;
+                    o = circuit.ones[cell] >>> arg % 64;
+                    u = circuit.unknown[cell] >>> arg % 64;
                     break;
                 default:
+                    o = now;
+                    u = 0;
                     break;
             }
         }
 
-        private long takeIndex(int k) {
+        /** A bit or a word by its index; x where there is none. */
+        private void pick(int k, int op) {
+            int arg = code.arg[k];
             top--;
-            return indexAt(top, code.given[k - 1]);
-        }
-
-        private void pushPart(int cell, int low, long all) {
-            push(circuit.ones[cell] >>> low & all, circuit.unknown[cell] >>> low & all);
-        }
-
-        private void pick(Signal signal, long index) {
-            if (signal.words > 0) {
-                int word = within(index, signal.wordLow, signal.words);
-                if (word < 0) {
-                    push(mask(signal.width), mask(signal.width));
-                } else {
-                    pushPart(signal.cell + word, 0, mask(64));
+            long index = index(top, code.given[k - 1]);
+            o = -1;
+            u = -1;
+            if (op == Code.CONSTANT_BIT) {
+                int bit = within(index, 0, 32);
+                if (bit >= 0) {
+                    o = code.ones[arg] >>> bit;
+                    u = 0;
                 }
                 return;
             }
-            int bit = within(index, signal.low, signal.width);
-            if (bit < 0) {
-                push(1, 1);
-            } else {
-                pushPart(signal.cell, bit, 1);
+            Signal signal = circuit.signals[arg];
+            boolean word = op == Code.WORD;
+            int at = word ? within(index, signal.wordLow, signal.words)
+                    : within(index, signal.low, signal.width);
+            if (at >= 0) {
+                int cell = word ? signal.cell + at : signal.cell;
+                int low = word ? 0 : at;
+                o = circuit.ones[cell] >>> low;
+                u = circuit.unknown[cell] >>> low;
             }
         }
 
-        private void copy(int copies, int width) {
-            long someOnes = ones[top - 1];
-            long someUnknown = unknown[top - 1];
-            for (int k = 1; k < copies; k++) {
-                put(ones[top - 1] << width | someOnes, unknown[top - 1] << width | someUnknown,
-                        mask(64));
+        private void join(int k, int op) {
+            int width = code.given[k - 1] & Code.WIDTH;
+            if (op == Code.JOIN) {
+                top -= 2;
+                o = ones[top] << width | ones[top + 1];
+                u = unknown[top] << width | unknown[top + 1];
+                return;
+            }
+            top--;
+            o = ones[top];
+            u = unknown[top];
+            if (op == Code.COPIES) {
+                for (int copy = 1; copy < code.arg[k]; copy++) {
+                    o = o << width | ones[top];
+                    u = u << width | unknown[top];
+                }
             }
         }
 
@@ -1273,200 +1297,229 @@ public final class SignalTheatre {
             return unknown[at] == 0 ? 0 : 2;
         }
 
-        private static int opposite(int bit) {
-            return bit == 2 ? 2 : 1 - bit;
+        /** 0, 1, or x if it is 2; its opposite if it is turned. */
+        private void putBit(int bit, boolean turned) {
+            o = bit == 2 || bit == 1 != turned ? 1 : 0;
+            u = bit == 2 ? 1 : 0;
         }
 
         private void unary(int k, int sign) {
-            long all = mask(code.given[k - 1] & Code.WIDTH);
-            long o = ones[top - 1];
-            long u = unknown[top - 1];
+            top--;
+            o = ones[top];
+            u = unknown[top];
             switch (sign) {
                 case '+':
                     break;
                 case '-':
-                    put(u == 0 ? -o : -1, u == 0 ? 0 : -1, all);
+                    o = u == 0 ? -o : -1;
+                    u = u == 0 ? 0 : -1;
                     break;
                 case '~':
-                    put(~o | u, u, all);
+                    o = ~o | u;
                     break;
                 case '!':
-                    putBit(k, opposite(truth(top - 1)));
+                    putBit(truth(top), true);
                     break;
                 case '&':
                 case Tokens.NAND:
-                    int every = (~o & ~u & all) != 0 ? 0 : u != 0 ? 2 : 1;
-                    putBit(k, sign == '&' ? every : opposite(every));
+                    boolean zero = (~o & ~u & -1L >>> 64 - (code.given[k - 1] & Code.WIDTH)) != 0;
+                    putBit(zero ? 0 : u != 0 ? 2 : 1, sign != '&');
                     break;
                 case '|':
                 case Tokens.NOR:
-                    int any = truth(top - 1);
-                    putBit(k, sign == '|' ? any : opposite(any));
+                    putBit(truth(top), sign != '|');
                     break;
                 default:
-                    int odd = u != 0 ? 2 : Long.bitCount(o) & 1;
-                    putBit(k, sign == '^' ? odd : opposite(odd));
+                    putBit(u != 0 ? 2 : Long.bitCount(o) & 1, sign != '^');
                     break;
             }
         }
 
-        private void choose(int k) {
-            top -= 2;
-            long all = mask(code.given[k] & Code.WIDTH);
-            int truth = truth(top - 1);
+        private void choose() {
+            top -= 3;
+            int truth = truth(top);
             if (truth < 2) {
-                int taken = truth == 1 ? top : top + 1;
-                put(ones[taken], unknown[taken], all);
+                int taken = top + 2 - truth;
+                o = ones[taken];
+                u = unknown[taken];
                 return;
             }
-            long same = ~(ones[top] ^ ones[top + 1]) & ~unknown[top] & ~unknown[top + 1];
-            put(ones[top] & same | ~same, ~same, all);
+            long same = ~(ones[top + 1] ^ ones[top + 2]) & ~unknown[top + 1] & ~unknown[top + 2];
+            o = ones[top + 1] & same | ~same;
+            u = ~same;
         }
 
         private void binary(int k, int op) {
-            top--;
-            long o = ones[top - 1];
-            long u = unknown[top - 1];
-            long all = mask(code.given[k] & Code.WIDTH);
-            switch (Code.level(op)) {
+            top -= 2;
+            switch (code.arg[k]) {
                 case 1:
-                case 2:
-                    putBit(k, joined(op, truth(top - 1), truth(top)));
+                case Code.JOINING:
+                    decide(op == Tokens.BOTH ? 0 : 1);
                     break;
-                case 3:
-                    long one = o & ~u | ones[top] & ~unknown[top];
-                    long some = o | u | ones[top] | unknown[top];
-                    put(some, some & ~one, all);
+                case Code.COMPARING:
+                    compare(op);
                     break;
-                case 4:
-                    long odd = op == '^' ? o ^ ones[top] : ~(o ^ ones[top]);
-                    put(odd | u | unknown[top], u | unknown[top], all);
+                case Code.ORDERING:
+                    order(op, code.given[k - 1]);
                     break;
-                case 5:
-                    long full = (o | u) & (ones[top] | unknown[top]);
-                    put(full, full & (u | unknown[top]), all);
-                    break;
-                case 6:
-                    putBit(k, compared(op));
-                    break;
-                case 7:
-                    putBit(k, (u | unknown[top]) != 0 ? 2 : ordered(op, code.given[k - 1]));
-                    break;
-                case 8:
+                case Code.SHIFTING:
                     shift(op, code.given[k]);
                     break;
+                case 3:
+                case 4:
+                case 5:
+                    mix(op);
+                    break;
                 default:
-                    boolean zero = ones[top] == 0 && (op == '/' || op == '%');
-                    boolean known = (u | unknown[top]) == 0 && !zero;
-                    put(known ? reckoned(op, code.given[k]) : -1, known ? 0 : -1, all);
+                    if (op == '/' || op == '%') {
+                        divide(op, code.given[k]);
+                    } else {
+                        reckon(op);
+                    }
                     break;
             }
         }
 
-        private static int joined(int op, int one, int other) {
-            int deciding = op == Tokens.BOTH ? 0 : 1;
-            if (one == deciding || other == deciding) {
-                return deciding;
+        /** && and ||: one of them that is so decides. */
+        private void decide(int deciding) {
+            boolean one = (ones[top] & ~unknown[top]) != 0;
+            boolean other = (ones[top + 1] & ~unknown[top + 1]) != 0;
+            boolean oneZero = (ones[top] | unknown[top]) == 0;
+            boolean otherZero = (ones[top + 1] | unknown[top + 1]) == 0;
+            if (deciding == 1) {
+                o = oneZero && otherZero ? 0 : 1;
+                u = one || other || o == 0 ? 0 : 1;
+            } else {
+                o = oneZero || otherZero ? 0 : 1;
+                u = one && other || o == 0 ? 0 : 1;
             }
-            return one == 2 || other == 2 ? 2 : 1 - deciding;
         }
 
-        private int compared(int op) {
-            long some = unknown[top - 1] | unknown[top];
-            long differing = ones[top - 1] ^ ones[top];
+        /** & | ^ ~^. */
+        private void mix(int op) {
+            long one = ones[top] & ~unknown[top];
+            long other = ones[top + 1] & ~unknown[top + 1];
+            long some = ones[top] | unknown[top];
+            long others = ones[top + 1] | unknown[top + 1];
+            u = unknown[top] | unknown[top + 1];
+            switch (op) {
+                case '&':
+                    o = some & others;
+                    u &= o;
+                    break;
+                case '|':
+                    o = some | others;
+                    u = o & ~(one | other);
+                    break;
+                case '^':
+                    o = one ^ other | u;
+                    break;
+                default:
+                    o = ~(one ^ other) | u;
+                    break;
+            }
+        }
+
+        private void compare(int op) {
+            long some = unknown[top] | unknown[top + 1];
+            long differing = ones[top] ^ ones[top + 1];
+            boolean equal = differing == 0 && unknown[top] == unknown[top + 1];
+            u = 0;
             if (op == Tokens.SAME || op == Tokens.NOT_SAME) {
-                boolean same = differing == 0 && unknown[top - 1] == unknown[top];
-                return same == (op == Tokens.SAME) ? 1 : 0;
+                o = equal == (op == Tokens.SAME) ? 1 : 0;
+            } else if ((differing & ~some) == 0 && some != 0) {
+                o = 1;
+                u = 1;
+            } else {
+                o = equal == (op == Tokens.EQUAL) ? 1 : 0;
             }
-            int equal = (differing & ~some) != 0 ? 0 : some != 0 ? 2 : 1;
-            return op == Tokens.EQUAL ? equal : opposite(equal);
         }
 
-        private int ordered(int op, int shape) {
-            long one = ones[top - 1];
-            long other = ones[top];
-            int order = isBelow(one, other) ? -1 : one == other ? 0 : 1;
-            if ((shape & Code.SIGNED) != 0) {
-                order = Long.compare(asSigned(one, shape & Code.WIDTH),
-                        asSigned(other, shape & Code.WIDTH));
-            }
+        private void order(int op, int shape) {
+            // Without sign the order is that of the numbers with the highest bit turned.
+            int up = 64 - (shape & Code.WIDTH);
+            long turn = (shape & Code.SIGNED) != 0 ? 0 : Long.MIN_VALUE;
+            int order = Long.compare(ones[top] << up ^ turn, ones[top + 1] << up ^ turn);
+            u = (unknown[top] | unknown[top + 1]) != 0 ? 1 : 0;
+            boolean so;
             switch (op) {
                 case '<':
-                    return order < 0 ? 1 : 0;
+                    so = order < 0;
+                    break;
                 case '>':
-                    return order > 0 ? 1 : 0;
+                    so = order > 0;
+                    break;
                 case Tokens.AT_MOST:
-                    return order <= 0 ? 1 : 0;
+                    so = order <= 0;
+                    break;
                 default:
-                    return order >= 0 ? 1 : 0;
+                    so = order >= 0;
+                    break;
             }
-        }
-
-        /** Whether the one is less, both without sign. */
-        private static boolean isBelow(long one, long other) {
-            return one + Long.MIN_VALUE < other + Long.MIN_VALUE;
+            o = so || u != 0 ? 1 : 0;
         }
 
         private void shift(int op, int shape) {
             int width = shape & Code.WIDTH;
-            long all = mask(width);
-            if (unknown[top] != 0) {
-                put(-1, -1, all);
+            long by = ones[top + 1];
+            boolean far = by < 0 || by >= width;
+            o = ones[top];
+            u = unknown[top];
+            if (unknown[top + 1] != 0) {
+                o = -1;
+                u = -1;
+            } else if (op == Tokens.DOWN_SIGNED && (shape & Code.SIGNED) != 0) {
+                long places = far ? 63 : by;
+                o = o << 64 - width >> 64 - width >> places;
+                u = u << 64 - width >> 64 - width >> places;
+            } else if (far) {
+                o = 0;
+                u = 0;
+            } else if (op == Tokens.UP || op == Tokens.UP_SIGNED) {
+                o <<= by;
+                u <<= by;
+            } else {
+                o >>>= by;
+                u >>>= by;
+            }
+        }
+
+        /** + - *. */
+        private void reckon(int op) {
+            u = (unknown[top] | unknown[top + 1]) != 0 ? -1 : 0;
+            if (op == '+') {
+                o = ones[top] + ones[top + 1];
+            } else if (op == '-') {
+                o = ones[top] - ones[top + 1];
+            } else {
+                o = ones[top] * ones[top + 1];
+            }
+            o |= u;
+        }
+
+        private void divide(int op, int shape) {
+            int up = 64 - (shape & Code.WIDTH);
+            boolean signed = (shape & Code.SIGNED) != 0;
+            long one = signed ? ones[top] << up >> up : ones[top];
+            long other = signed ? ones[top + 1] << up >> up : ones[top + 1];
+            if ((unknown[top] | unknown[top + 1]) != 0 || other == 0) {
+                o = -1;
+                u = -1;
                 return;
             }
-            boolean far = ones[top] < 0 || ones[top] >= width;
-            int by = far ? 0 : (int) ones[top];
-            boolean signed = op == Tokens.DOWN_SIGNED && (shape & Code.SIGNED) != 0;
-            long o = ones[top - 1];
-            long u = unknown[top - 1];
+            long least = Long.MIN_VALUE;
+            long quotient;
             if (signed) {
-                int places = far ? 63 : by;
-                put(asSigned(o, width) >> places, asSigned(u, width) >> places, all);
-            } else if (far) {
-                put(0, 0, all);
-            } else if (op == Tokens.UP || op == Tokens.UP_SIGNED) {
-                put(o << by, u << by, all);
+                quotient = one / other;
+            } else if (other < 0) {
+                quotient = one + least < other + least ? 0 : 1;
             } else {
-                put(o >>> by, u >>> by, all);
+                // Half of it can be divided with sign; what is left over may hold one more.
+                quotient = (one >>> 1) / other << 1;
+                quotient += one - quotient * other + least < other + least ? 0 : 1;
             }
-        }
-
-        /** + - * / % of numbers without x and z; the right one is not 0 for / and %. */
-        private long reckoned(int op, int shape) {
-            long one = ones[top - 1];
-            long other = ones[top];
-            boolean signed = (shape & Code.SIGNED) != 0;
-            switch (op) {
-                case '+':
-                    return one + other;
-                case '-':
-                    return one - other;
-                case '*':
-                    return one * other;
-                default:
-                    break;
-            }
-            if (signed) {
-                one = asSigned(one, shape & Code.WIDTH);
-                other = asSigned(other, shape & Code.WIDTH);
-            }
-            if (other == 0) {
-                return 0;
-            }
-            long quotient = signed ? one / other : quotient(one, other);
-            return op == '/' ? quotient : one - quotient * other;
-        }
-
-        /** Both without sign, the divisor not 0. */
-        private static long quotient(long one, long other) {
-            if (other < 0) {
-                return isBelow(one, other) ? 0 : 1;
-            }
-            if (other == 0) {
-                return 0;
-            }
-            long near = (one >>> 1) / other << 1;
-            return isBelow(one - near * other, other) ? near : near + 1;
+            o = op == '/' ? quotient : one - quotient * other;
+            u = 0;
         }
     }
 
@@ -1476,29 +1529,30 @@ public final class SignalTheatre {
         static final int READ = 0;
         static final int VARIABLES = 1;
         static final int NETS = 2;
-        // What a NAME is; a parameter that was linked is known only from its own place on.
+        // What a NAME is.
         private static final int PARAMETER = 0;
         private static final int SIGNAL = 1;
         private static final int INSTANCE = 2;
-        private static final int GIVEN = 3;
-        private static final int LEFT_OUT = 4;
+        /** Of a parameter that is linked, but by an empty link. */
+        private static final int LEFT_OUT = 3;
         /** A parameter or localparam has five TOKENS. */
         private static final int MOST_SYMBOLS = MOST_TOKENS / 5 + MOST_SIGNALS + MOST_INSTANCES;
 
         private final Tokens tokens;
         private final Faults faults;
-        private final Worth worth = new Worth();
+        private final Worth worth;
         private Circuit circuit;
         private Code code;
         int scope;
         boolean on;
         /** Whether the last CONSTANT is one, and what stands for it in another one if not. */
         boolean sound;
-        private int flaw;
+        int flaw;
         int leftFrom;
         int leftWidth;
         private final int[] head = new int[Tokens.MOST_NAMES];
         private final int[] symbolName = new int[MOST_SYMBOLS];
+        /** ~ of the scope for a parameter that is linked and not known yet. */
         private final int[] symbolScope = new int[MOST_SYMBOLS];
         private final int[] symbolSort = new int[MOST_SYMBOLS];
         private final int[] symbolWorth = new int[MOST_SYMBOLS];
@@ -1506,9 +1560,10 @@ public final class SignalTheatre {
         private final int[] symbolBelow = new int[MOST_SYMBOLS];
         int symbols;
 
-        Maker(Tokens someTokens, Faults someFaults) {
+        Maker(Tokens someTokens, Faults someFaults, Worth someWorth) {
             tokens = someTokens;
             faults = someFaults;
+            worth = someWorth;
         }
 
         void open(Circuit made) {
@@ -1519,23 +1574,18 @@ public final class SignalTheatre {
             Arrays.fill(head, 0, tokens.names, -1);
         }
 
-        void note(int number, int token) {
-            if (on) {
-                faults.note(number, tokens.place[token]);
-            }
+        void turn(boolean toOn) {
+            on = toOn;
+            faults.on = toOn;
         }
 
+        /** What a NAME is in a scope, -1: it is not known. */
         int find(int token, int where) {
             int symbol = head[tokens.info[token]];
             while (symbol >= 0 && symbolScope[symbol] != where) {
                 symbol = symbolBelow[symbol];
             }
             return symbol;
-        }
-
-        private int known(int token) {
-            int symbol = find(token, scope);
-            return symbol >= 0 && symbolSort[symbol] < GIVEN ? symbol : -1;
         }
 
         private void add(int token, int where, int sort, int worthOf) {
@@ -1558,39 +1608,34 @@ public final class SignalTheatre {
             symbols = mark;
         }
 
+        /** A parameter is linked, with a value or by an empty link. */
+        void give(int token, int inside, boolean empty, long value) {
+            add(token, ~inside, empty ? LEFT_OUT : PARAMETER, (int) value);
+        }
+
         /** A linked parameter is known from now on; answers whether it has got its value so. */
         boolean isGiven(int token) {
-            int symbol = on ? find(token, scope) : -1;
-            if (symbol < 0 || symbolSort[symbol] != GIVEN) {
+            int symbol = on ? find(token, ~scope) : -1;
+            if (symbol < 0 || symbolSort[symbol] == LEFT_OUT) {
                 return false;
             }
-            symbolSort[symbol] = PARAMETER;
+            symbolScope[symbol] = scope;
             return true;
         }
 
-        void give(int token, int where, boolean empty, long value) {
-            add(token, where, empty ? LEFT_OUT : GIVEN, (int) value);
-        }
-
-        void parameter(int token, int first) {
+        void parameter(int token, long value) {
             if (!on) {
                 return;
             }
-            int value = (int) constant(first, true);
-            int symbol = find(token, scope);
-            if (symbol < 0) {
-                add(token, scope, PARAMETER, value);
-            } else if (symbolSort[symbol] == LEFT_OUT) {
-                symbolSort[symbol] = PARAMETER;
-                symbolWorth[symbol] = value;
-            } else {
-                note(2, token);
+            if (find(token, scope) >= 0) {
+                faults.note(2, token);
             }
+            add(token, scope, PARAMETER, (int) value);
         }
 
         void nameInstance(int token) {
-            if (known(token) >= 0) {
-                note(2, token);
+            if (find(token, scope) >= 0) {
+                faults.note(2, token);
             }
             add(token, scope, INSTANCE, 0);
         }
@@ -1599,11 +1644,11 @@ public final class SignalTheatre {
             if (!on) {
                 return;
             }
-            if (known(token) >= 0) {
-                note(2, token);
+            if (find(token, scope) >= 0) {
+                faults.note(2, token);
             }
             if (circuit.signalCount >= MOST_SIGNALS || circuit.words + mould.words > MOST_WORDS) {
-                note(5, token);
+                faults.note(5, token);
             }
             faults.settle();
             add(token, scope, SIGNAL, circuit.signalCount);
@@ -1611,23 +1656,23 @@ public final class SignalTheatre {
                     tokens.nameLength[tokens.info[token]]);
         }
 
-        /** The port of an instance that a link names and that is not linked yet; null: none. */
-        Signal port(int token, int where) {
-            int symbol = find(token, where);
+        /** The port of an instance that a link names and that is not linked yet, -1: none. */
+        int port(int token, int inside) {
+            int symbol = find(token, inside);
             if (symbol >= 0 && symbolSort[symbol] == SIGNAL) {
                 Signal port = circuit.signals[symbolWorth[symbol]];
                 if (!port.linked) {
                     port.linked = true;
-                    return port;
+                    return symbolWorth[symbol];
                 }
             }
-            note(2, token);
-            return null;
+            faults.note(2, token);
+            return -1;
         }
 
         void checkRoom(int token) {
-            if (on && circuit.isFull()) {
-                note(5, token);
+            if (circuit.isFull()) {
+                faults.note(5, token);
             }
         }
 
@@ -1640,14 +1685,14 @@ public final class SignalTheatre {
             lookAt(root);
             long value = 0;
             if (flaw == Code.FOREIGN) {
-                note(3, first);
+                faults.note(3, first);
             } else if (sound) {
                 int own = code.own[root];
                 code.shape(root, Math.max(own & Code.WIDTH, 32) | own & Code.SIGNED);
                 worth.work(circuit, root);
                 value = asSigned(worth.ones(), code.given[root] & Code.WIDTH);
                 if (worth.unknown() != 0 || !isParameter && value != (int) value) {
-                    note(4, first);
+                    faults.note(4, first);
                     sound = false;
                 }
             }
@@ -1670,27 +1715,29 @@ public final class SignalTheatre {
             }
         }
 
-        void checkCopies(long copies, int first) {
-            if (on && sound && copies < 1) {
-                note(4, first);
-            }
+        /** Of two CONSTANTS that belong together both must be sound. */
+        void heedOther(boolean otherSound, int otherFlaw) {
+            sound = sound && otherSound;
+            flaw = Math.max(flaw, otherFlaw);
         }
 
-        private void leaf(int op, int arg, int shape) {
-            code.node(op, arg, code.nodes, shape);
+        void checkCopies(long copies, int first) {
+            if (on && sound && copies < 1) {
+                faults.note(4, first);
+            }
         }
 
         void number(int token) {
             if (on) {
-                tokens.number(tokens.place[token]);
-                int shape = tokens.signed ? tokens.width | Code.SIGNED : tokens.width;
-                code.constant(tokens.ones, tokens.unknown, shape);
+                int number = tokens.info[token];
+                code.constant(tokens.numberOnes[number], tokens.numberUnknown[number],
+                        tokens.numberShape[number]);
             }
         }
 
         void now() {
             if (on) {
-                leaf(Code.NOW, 0, 64);
+                code.node(Code.NOW, 0, code.nodes, 64);
             }
         }
 
@@ -1698,23 +1745,29 @@ public final class SignalTheatre {
             if (!on) {
                 return;
             }
-            int symbol = known(token);
+            int symbol = find(token, scope);
             if (symbol < 0) {
-                note(2, token);
-                leaf(Code.UNKNOWN, 0, 1);
+                faults.note(2, token);
+                code.node(Code.UNKNOWN, 0, code.nodes, 1);
             } else if (symbolSort[symbol] == PARAMETER) {
                 code.constant(symbolWorth[symbol] & 0xffffffffL, 0, 32 | Code.SIGNED);
-            } else if (isMemory(symbol) || symbolSort[symbol] == INSTANCE) {
-                note(3, token);
-                leaf(Code.FOREIGN, 0, 1);
+            } else if (isWhole(symbol)) {
+                readSignal(symbolWorth[symbol]);
             } else {
-                int v = symbolWorth[symbol];
-                leaf(Code.WHOLE, v, circuit.signals[v].shape());
+                faults.note(3, token);
+                code.node(Code.FOREIGN, 0, code.nodes, 1);
             }
         }
 
-        private boolean isMemory(int symbol) {
-            return symbolSort[symbol] == SIGNAL && circuit.signals[symbolWorth[symbol]].words > 0;
+        void readSignal(int v) {
+            if (on) {
+                code.node(Code.WHOLE, v, code.nodes, circuit.signals[v].shape());
+            }
+        }
+
+        /** Whether a NAME is a VARIABLE or NET without words. */
+        private boolean isWhole(int symbol) {
+            return symbolSort[symbol] == SIGNAL && circuit.signals[symbolWorth[symbol]].words == 0;
         }
 
         /** NAME[E]: E is the last EXPR. */
@@ -1723,20 +1776,20 @@ public final class SignalTheatre {
                 return;
             }
             int from = code.first[code.root()];
-            int symbol = known(token);
+            int symbol = find(token, scope);
             if (symbol < 0) {
-                note(2, token);
+                faults.note(2, token);
                 code.node(Code.UNKNOWN, 0, from, 1);
             } else if (symbolSort[symbol] == PARAMETER) {
                 code.constantBit(symbolWorth[symbol] & 0xffffffffL, from);
-            } else if (symbolSort[symbol] == INSTANCE) {
-                note(3, token);
-                code.node(Code.FOREIGN, 0, from, 1);
-            } else {
+            } else if (isWhole(symbol)) {
+                code.node(Code.BIT, symbolWorth[symbol], from, 1);
+            } else if (symbolSort[symbol] == SIGNAL) {
                 int v = symbolWorth[symbol];
-                boolean memory = isMemory(symbol);
-                code.node(memory ? Code.WORD : Code.BIT, v, from,
-                        memory ? circuit.signals[v].width : 1);
+                code.node(Code.WORD, v, from, circuit.signals[v].width);
+            } else {
+                faults.note(3, token);
+                code.node(Code.FOREIGN, 0, from, 1);
             }
         }
 
@@ -1744,39 +1797,41 @@ public final class SignalTheatre {
             if (!on) {
                 return;
             }
-            int symbol = known(token);
+            int symbol = find(token, scope);
+            boolean parameter = symbol >= 0 && symbolSort[symbol] == PARAMETER;
             if (symbol < 0) {
-                note(2, token);
-                leaf(Code.UNKNOWN, 0, 1);
-            } else if (isMemory(symbol) || symbolSort[symbol] == INSTANCE) {
-                note(3, token);
-                leaf(Code.FOREIGN, 0, 1);
-            } else if (!sound) {
-                leaf(flaw, 0, 1);
-            } else if (symbolSort[symbol] == PARAMETER) {
-                int part = part(0, 32, high, low, first);
-                code.constant(symbolWorth[symbol] >>> part & mask(partWidth(high, low)), 0,
-                        partWidth(high, low));
+                faults.note(2, token);
+                code.node(Code.UNKNOWN, 0, code.nodes, 1);
+                return;
+            }
+            if (!parameter && !isWhole(symbol)) {
+                faults.note(3, token);
+                code.node(Code.FOREIGN, 0, code.nodes, 1);
+                return;
+            }
+            if (!sound) {
+                code.node(parameter ? flaw : Code.FOREIGN, 0, code.nodes, 1);
+                return;
+            }
+            int what = symbolWorth[symbol];
+            int lowest = parameter ? 0 : circuit.signals[what].low;
+            int width = parameter ? 32 : circuit.signals[what].width;
+            int part = partAt(lowest, width, high, low);
+            if (part < 0) {
+                faults.note(4, first);
+                code.node(parameter ? Code.UNKNOWN : Code.FOREIGN, 0, code.nodes, 1);
+            } else if (parameter) {
+                int bits = (int) (high - low + 1);
+                code.constant(what >>> part & mask(bits), 0, bits);
             } else {
-                Signal signal = circuit.signals[symbolWorth[symbol]];
-                int part = part(signal.low, signal.width, high, low, first);
-                leaf(Code.PART, symbolWorth[symbol] * 64 + part, partWidth(high, low));
+                code.node(Code.PART, what * 64 + part, code.nodes, (int) (high - low + 1));
             }
         }
 
-        /** Where a part begins, 0 if it is not there. */
-        private int part(int lowest, int width, long high, long low, int first) {
-            int from = within(low, lowest, width);
-            if (high < low || from < 0 || within(high, lowest, width) < 0) {
-                note(4, first);
-                return 0;
-            }
-            return from;
-        }
-
-        /** Kept in bounds where the part itself is not there. */
-        private static int partWidth(long high, long low) {
-            return (int) Math.max(1, Math.min(64, high - low + 1));
+        /** Where a part begins, -1 if it is not there. */
+        private static int partAt(int lowest, int width, long high, long low) {
+            boolean there = low >= lowest && high >= low && high - lowest < width;
+            return there ? (int) (low - lowest) : -1;
         }
 
         void binary(int op) {
@@ -1787,19 +1842,20 @@ public final class SignalTheatre {
             int left = Math.max(0, code.first[right] - 1);
             int level = Code.level(op);
             int shape = 1;
-            if (level == 8) {
-                shape = code.own[left];
-            } else if (level == 9 || level == 10 || level >= 3 && level <= 5) {
-                shape = Code.wider(code.own[left], code.own[right]);
+            if (level == Code.SHIFTING) {
+                shape = code.own[left] & Code.SHAPE | Code.OPEN;
+            } else if (level > Code.SHIFTING || level > Code.JOINING && level < Code.COMPARING) {
+                shape = Code.wider(code.own[left], code.own[right]) | Code.OPEN;
             }
-            code.node(op, 0, code.first[left], shape);
+            code.node(op, level, code.first[left], shape);
         }
 
         void unary(int sign) {
             if (on) {
                 int root = code.root();
-                boolean keeps = sign == '+' || sign == '-' || sign == '~';
-                code.node(Code.UNARY + sign, 0, code.first[root], keeps ? code.own[root] : 1);
+                boolean open = sign == '+' || sign == '-' || sign == '~';
+                code.node(Code.UNARY + sign, 0, code.first[root],
+                        open ? code.own[root] & Code.SHAPE | Code.OPEN : 1);
             }
         }
 
@@ -1809,7 +1865,7 @@ public final class SignalTheatre {
                 int middle = Math.max(0, code.first[last] - 1);
                 int condition = Math.max(0, code.first[middle] - 1);
                 code.node('?', 0, code.first[condition],
-                        Code.wider(code.own[middle], code.own[last]));
+                        Code.wider(code.own[middle], code.own[last]) | Code.OPEN);
             }
         }
 
@@ -1841,19 +1897,13 @@ public final class SignalTheatre {
 
         void checkBraces(int token) {
             if (on && (code.own[code.root()] & Code.WIDTH) > 64) {
-                noteWide(token);
+                faults.note(Faults.WIDE, token);
             }
         }
 
         void checkLeftBraces(int token, int widthBefore) {
-            if (on && leftWidth - widthBefore > 64) {
-                noteWide(token);
-            }
-        }
-
-        private void noteWide(int token) {
-            if (!faults.hard) {
-                faults.noteWide(tokens.place[token]);
+            if (leftWidth - widthBefore > 64) {
+                faults.note(Faults.WIDE, token);
             }
         }
 
@@ -1866,10 +1916,8 @@ public final class SignalTheatre {
         }
 
         void beginLeft() {
-            if (on) {
-                leftFrom = code.lefts;
-                leftWidth = 0;
-            }
+            leftFrom = code.lefts;
+            leftWidth = 0;
         }
 
         private void left(int signal, int way, int index, int width) {
@@ -1879,9 +1927,9 @@ public final class SignalTheatre {
 
         /** The VARIABLE or NET that a LEFT names, -1 if it is not of the right kind. */
         private int target(int token, int use, boolean indexed) {
-            int symbol = known(token);
+            int symbol = find(token, scope);
             if (symbol < 0) {
-                note(2, token);
+                faults.note(2, token);
                 return -1;
             }
             if (symbolSort[symbol] == SIGNAL) {
@@ -1891,7 +1939,7 @@ public final class SignalTheatre {
                     return symbolWorth[symbol];
                 }
             }
-            note(3, token);
+            faults.note(3, token);
             return -1;
         }
 
@@ -1902,55 +1950,60 @@ public final class SignalTheatre {
             }
         }
 
-        /** NAME[E] as a LEFT: E is the last EXPR. */
-        void leftBit(int token, int use, int first) {
-            if (!on) {
-                return;
+        void leftPort(int v) {
+            if (v >= 0) {
+                left(v, Code.WHOLE, 0, circuit.signals[v].width);
             }
-            long index = use == NETS ? constant(first, false) : 0;
-            int root = use == NETS ? 0 : plain();
-            int v = target(token, use, true);
-            if (v < 0 || use == NETS && !sound) {
-                return;
+        }
+
+        /** NAME[E], in a STATEMENT. */
+        void leftBit(int token, int root) {
+            int v = on ? target(token, VARIABLES, true) : -1;
+            if (v >= 0) {
+                Signal signal = circuit.signals[v];
+                boolean memory = signal.words > 0;
+                left(v, memory ? Code.WORD : Code.BIT, root, memory ? signal.width : 1);
             }
-            Signal signal = circuit.signals[v];
-            if (use == NETS) {
-                int bit = within(index, signal.low, signal.width);
+        }
+
+        /** NAME[E], in an ASSIGN: a bit that is not there is driven by nothing. */
+        void drivenBit(int token, long index) {
+            int v = on ? target(token, NETS, true) : -1;
+            if (v >= 0 && sound) {
+                int bit = within(index, circuit.signals[v].low, circuit.signals[v].width);
                 left(v, bit < 0 ? Code.NOWHERE : Code.PART, Math.max(0, bit), 1);
-            } else if (signal.words > 0) {
-                left(v, Code.WORD, root, signal.width);
-            } else {
-                left(v, Code.BIT, root, 1);
             }
         }
 
         void leftPart(int token, int use, long high, long low, int first) {
             int v = on ? target(token, use, false) : -1;
-            if (v >= 0 && sound) {
-                Signal signal = circuit.signals[v];
-                int part = part(signal.low, signal.width, high, low, first);
-                left(v, Code.PART, part, partWidth(high, low));
+            if (v < 0 || !sound) {
+                return;
+            }
+            int part = partAt(circuit.signals[v].low, circuit.signals[v].width, high, low);
+            if (part < 0) {
+                faults.note(4, first);
+            } else {
+                left(v, Code.PART, part, (int) (high - low + 1));
             }
         }
 
         /** The last EXPR as it is by itself. */
         int plain() {
-            if (!on) {
-                return 0;
-            }
             int root = code.root();
-            code.shape(root, code.own[root]);
+            if (on) {
+                code.shape(root, code.own[root]);
+            }
             return root;
         }
 
         /** The last EXPR as it is assigned to the last LEFT. */
         int assigned() {
-            if (!on || faults.isFound()) {
-                return 0;
-            }
             int root = code.root();
-            int own = code.own[root];
-            code.shape(root, Math.max(own & Code.WIDTH, leftWidth) | own & Code.SIGNED);
+            if (on && !faults.isFound()) {
+                int own = code.own[root];
+                code.shape(root, Math.max(own & Code.WIDTH, leftWidth) | own & Code.SIGNED);
+            }
             return root;
         }
 
@@ -1961,32 +2014,16 @@ public final class SignalTheatre {
             }
         }
 
-        void readPort(int token, int where) {
-            int symbol = on ? find(token, where) : -1;
-            if (symbol >= 0) {
-                int v = symbolWorth[symbol];
-                leaf(Code.WHOLE, v, circuit.signals[v].shape());
-            }
-        }
-
-        void leftPort(int token, int where) {
-            int symbol = on ? find(token, where) : -1;
-            if (symbol >= 0) {
-                int v = symbolWorth[symbol];
-                left(v, Code.WHOLE, 0, circuit.signals[v].width);
-            }
-        }
-
-        /** An EVENT to wait for: -1 for any bit, -2 for one that is not there. */
+        /** An EVENT to wait for: its bit is -1 for any, -2 for one that is not there. */
         void await(int edge, int token, boolean indexed, long index) {
             if (!on) {
                 return;
             }
-            int symbol = known(token);
+            int symbol = find(token, scope);
             if (symbol < 0) {
-                note(2, token);
-            } else if (symbolSort[symbol] != SIGNAL || isMemory(symbol)) {
-                note(3, token);
+                faults.note(2, token);
+            } else if (!isWhole(symbol)) {
+                faults.note(3, token);
             } else {
                 Signal signal = circuit.signals[symbolWorth[symbol]];
                 int bit = edge == 0 ? -1 : 0;
@@ -2036,7 +2073,7 @@ public final class SignalTheatre {
         }
 
         int shapeOf(int root) {
-            return on ? code.own[root] : 0;
+            return on ? code.own[root] & Code.SHAPE : 0;
         }
 
         void giveShape(int root, int shape) {
@@ -2074,10 +2111,6 @@ public final class SignalTheatre {
             waitingCount = 0;
         }
 
-        void fail() {
-            faults.refuse(1, tokens.place[at]);
-        }
-
         int kind() {
             return tokens.kind[at];
         }
@@ -2086,9 +2119,10 @@ public final class SignalTheatre {
             return tokens.kind[at] == kind;
         }
 
+        /** Goes on by a TOKEN of a kind; any other one is wrong there, and one that is too deep. */
         int take(int kind) {
             if (tokens.kind[at] != kind || depth > MOST_DEPTH || at >= tokens.size - 1) {
-                fail();
+                faults.refuse(1, tokens.place[at]);
             }
             at++;
             return at - 1;
@@ -2116,7 +2150,7 @@ public final class SignalTheatre {
         /** The TOKEN behind the brackets that open at a TOKEN. */
         int behind(int token) {
             int open = 0;
-            for (int k = token; k < tokens.size; k++) {
+            for (int k = token; k < tokens.size - 1; k++) {
                 int kind = tokens.kind[k];
                 if (kind == '(' || kind == '[' || kind == '{') {
                     open++;
@@ -2206,7 +2240,7 @@ public final class SignalTheatre {
                     maker.number(take(kind));
                     break;
                 case Tokens.NAME:
-                    chosen(Maker.READ);
+                    named();
                     break;
                 case '{':
                     braces();
@@ -2261,15 +2295,11 @@ public final class SignalTheatre {
             }
         }
 
-        /** NAME, with an index or a part or none, in an EXPR or as a LEFT. */
-        private void chosen(int use) {
+        /** NAME in an EXPR, with an index or a part or none. */
+        private void named() {
             int name = take(Tokens.NAME);
             if (!sees('[')) {
-                if (use == Maker.READ) {
-                    maker.readWhole(name);
-                } else {
-                    maker.leftWhole(name, use);
-                }
+                maker.readWhole(name);
                 return;
             }
             open('[');
@@ -2277,44 +2307,29 @@ public final class SignalTheatre {
             choice();
             if (sees(':')) {
                 ends(first);
-                if (use == Maker.READ) {
-                    maker.readPart(name, high, low, first);
-                } else {
-                    maker.leftPart(name, use, high, low, first);
-                }
-            } else if (use == Maker.READ) {
-                maker.readBit(name);
+                maker.readPart(name, high, low, first);
             } else {
-                maker.leftBit(name, use, first);
+                maker.readBit(name);
             }
             close(']');
         }
 
-        /** The first end has been read; the ends go to high and low. */
-        private void ends(int first) {
+        /** The first end of a RANGE or part has been read; the ends go to high and low. */
+        void ends(int first) {
             long end = maker.constant(first, false);
             boolean sound = maker.sound;
+            int flaw = maker.flaw;
             take(':');
             int second = at;
             choice();
             low = maker.constant(second, false);
             high = end;
-            maker.sound = maker.sound && sound;
-        }
-
-        /** RANGE; answers its first EXPR's TOKEN. */
-        int range() {
-            open('[');
-            int first = at;
-            choice();
-            ends(first);
-            close(']');
-            return first;
+            maker.heedOther(sound, flaw);
         }
 
         void left(int use) {
             if (!sees('{')) {
-                chosen(use);
+                leftName(use);
                 return;
             }
             int widthBefore = maker.leftWidth;
@@ -2327,13 +2342,33 @@ public final class SignalTheatre {
             maker.checkLeftBraces(token, widthBefore);
         }
 
+        private void leftName(int use) {
+            int name = take(Tokens.NAME);
+            if (!sees('[')) {
+                maker.leftWhole(name, use);
+                return;
+            }
+            open('[');
+            int first = at;
+            choice();
+            if (sees(':')) {
+                ends(first);
+                maker.leftPart(name, use, high, low, first);
+            } else if (use == Maker.NETS) {
+                maker.drivenBit(name, maker.constant(first, false));
+            } else {
+                maker.leftBit(name, maker.plain());
+            }
+            close(']');
+        }
+
         /** The EXPR of a link to an output, which must have the form of a LEFT. */
         void outward() {
             if (!isLeft()) {
-                maker.note(3, at);
+                faults.note(3, at);
                 choice();
             } else if (sees(Tokens.NAME)) {
-                chosen(Maker.NETS);
+                leftName(Maker.NETS);
             } else {
                 int widthBefore = maker.leftWidth;
                 int token = open('{');
@@ -2532,7 +2567,9 @@ public final class SignalTheatre {
                 maker.patch(next, maker.here());
             }
             close(Tokens.ENDCASE);
-            finish(root, first, behind, shape);
+            maker.giveShape(root, shape);
+            shapeLabels(first, shape);
+            landJumps(behind);
         }
 
         /** The EXPRS of a choice, or default; answers the shape of all so far. */
@@ -2557,8 +2594,7 @@ public final class SignalTheatre {
             return shape;
         }
 
-        private void finish(int root, int first, int behind, int shape) {
-            maker.giveShape(root, shape);
+        private void shapeLabels(int first, int shape) {
             int choice = first;
             for (int k = 0; k < MOST_INPUT && maker.on; k++) {
                 for (int label = 0; label < maker.line(choice + 2); label++) {
@@ -2569,6 +2605,9 @@ public final class SignalTheatre {
                     break;
                 }
             }
+        }
+
+        private void landJumps(int behind) {
             int jump = maker.line(behind);
             for (int k = 0; k < MOST_INPUT && jump > 0; k++) {
                 int before = maker.line(jump);
@@ -2622,7 +2661,7 @@ public final class SignalTheatre {
             take(Tokens.FOR);
             open('(');
             int begin = loopAssignment();
-            emitSet(begin, maker.leftFrom, maker.lefts());
+            emitTo(Code.SET, begin, maker.leftFrom, maker.lefts());
             take(';');
             int test = maker.here();
             choice();
@@ -2634,7 +2673,7 @@ public final class SignalTheatre {
             close(')');
             maker.emit(Code.PAY);
             statement(1);
-            emitSet(step, from, to);
+            emitTo(Code.SET, step, from, to);
             jump(test);
             maker.patch(exit, maker.here());
         }
@@ -2652,59 +2691,48 @@ public final class SignalTheatre {
         private void assignment() {
             maker.beginLeft();
             left(Maker.VARIABLES);
-            if (again(Tokens.AT_MOST)) {
-                later();
-            } else {
+            boolean later = again(Tokens.AT_MOST);
+            if (!later) {
                 take('=');
-                if (sees('#') || sees('@')) {
-                    held();
-                } else {
-                    choice();
-                    emitSet(maker.assigned(), maker.leftFrom, maker.lefts());
-                }
             }
+            boolean waits = !later && (sees('#') || sees('@'));
+            int delay = -1;
+            int hole = -1;
+            if (waits) {
+                maker.emit(Code.HOLD);
+                hole = hole();
+            }
+            if (sees('@')) {
+                if (later) {
+                    faults.note(3, at);
+                }
+                take('@');
+                events();
+            } else if (waits) {
+                delay();
+            } else if (again('#')) {
+                primary();
+                delay = maker.plain();
+            }
+            choice();
             take(';');
+            int root = maker.assigned();
+            if (waits) {
+                maker.patch(hole, root);
+                emitTo(Code.PUT, 0, maker.leftFrom, maker.lefts());
+            } else if (later) {
+                emitTo(Code.AFTER, root, maker.leftFrom, maker.lefts());
+                maker.emit(delay);
+            } else {
+                emitTo(Code.SET, root, maker.leftFrom, maker.lefts());
+            }
         }
 
-        private void emitSet(int root, int from, int to) {
-            maker.emit(Code.SET);
+        private void emitTo(int what, int root, int from, int to) {
+            maker.emit(what);
             maker.emit(root);
             maker.emit(from);
             maker.emit(to);
-        }
-
-        /** A = # E R, A = @ R. */
-        private void held() {
-            maker.emit(Code.HOLD);
-            int hole = hole();
-            if (sees('#')) {
-                delay();
-            } else {
-                take('@');
-                events();
-            }
-            choice();
-            maker.patch(hole, maker.assigned());
-            maker.emit(Code.PUT);
-            maker.emit(maker.leftFrom);
-            maker.emit(maker.lefts());
-        }
-
-        private void later() {
-            int delay = -1;
-            if (again('#')) {
-                primary();
-                delay = maker.plain();
-            } else if (sees('@')) {
-                maker.note(3, take('@'));
-                events();
-            }
-            choice();
-            maker.emit(Code.AFTER);
-            maker.emit(maker.assigned());
-            maker.emit(maker.leftFrom);
-            maker.emit(maker.lefts());
-            maker.emit(delay);
         }
 
         private void show(int kind) {
@@ -2745,19 +2773,21 @@ public final class SignalTheatre {
         private static final int MOST_MODULES = MOST_INPUT / 18 + 1;
         private static final int MOST_MEMORY = 4096;
 
-        private final Tokens tokens = new Tokens();
+        private final Tokens tokens;
         private final Faults faults;
         private final Maker maker;
         private final Reader reader;
         private Circuit circuit;
         /** What the next NAME is declared as. */
         private final Signal mould = new Signal();
-        private final int[] moduleName = new int[MOST_MODULES];
         private final int[] moduleStart = new int[MOST_MODULES];
         private final int[] moduleEnd = new int[MOST_MODULES];
         private int modules;
-        /** Which NAMES are instantiated as MODULES. */
-        private final boolean[] instantiated = new boolean[Tokens.MOST_NAMES];
+        /** 1 for NAMES that are instantiated as MODULES. */
+        private final int[] instantiated = new int[Tokens.MOST_NAMES];
+        /** Whether a MODULE has begun and not ended. */
+        private boolean inside;
+        private boolean done;
         /** For each instance that is open: where it is gone on behind it, and with what NAMES. */
         private final int[] backTo = new int[MOST_DEEP + 1];
         private final int[] scopeOutside = new int[MOST_DEEP + 1];
@@ -2766,85 +2796,53 @@ public final class SignalTheatre {
         private int instances;
         private int tokensDone;
 
-        Builder(Faults someFaults) {
+        Builder(Tokens someTokens, Faults someFaults, Maker someMaker, Reader someReader) {
+            tokens = someTokens;
             faults = someFaults;
-            maker = new Maker(tokens, someFaults);
-            reader = new Reader(tokens, someFaults, maker);
+            maker = someMaker;
+            reader = someReader;
         }
 
-        /** Cuts a TEXT and looks whether its form is right. */
-        void check(Circuit made, int length) {
+        /** Cuts a TEXT, whose form is looked at then, ITEM by ITEM. */
+        void open(Circuit made, int length) {
             circuit = made;
             faults.forget();
             tokens.cut(made.text, length);
-            Arrays.fill(instantiated, 0, tokens.names, false);
+            Arrays.fill(instantiated, 0, tokens.names, 0);
             maker.open(made);
-            maker.on = false;
+            maker.turn(false);
             reader.begin();
             modules = 0;
-            for (int k = 0; k < MOST_MODULES; k++) {
-                module();
-                if (reader.sees(Tokens.END)) {
-                    break;
-                }
-            }
+            inside = false;
+            done = false;
         }
 
-        private void module() {
-            int start = reader.at;
-            head();
-            for (int k = 0; k < MOST_INPUT && !reader.sees(Tokens.ENDMODULE); k++) {
-                item();
-            }
-            reader.take(Tokens.ENDMODULE);
-            if (modules < MOST_MODULES) {
-                moduleName[modules] = start + 1;
-                moduleStart[modules] = start;
-                moduleEnd[modules] = reader.at;
-                modules++;
-            }
+        boolean isOpen() {
+            return !done;
         }
 
-        /** Makes the circuit of the TEXT that was checked. */
+        /** Makes the circuit of the TEXT whose form is right then, ITEM by ITEM again. */
         void flatten() {
             int top = top();
-            maker.on = true;
+            maker.turn(true);
             instances = 0;
             deep = 0;
             tokensDone = moduleEnd[top] - moduleStart[top];
             maker.scope = circuit.addScope(0, 0, 0);
             reader.at = moduleStart[top];
-            head();
-            for (int k = 0; k < MOST_TOKENS && deep >= 0; k++) {
-                if (reader.sees(Tokens.ENDMODULE)) {
-                    leave();
-                } else if (reader.sees(Tokens.NAME)) {
-                    instance();
-                } else {
-                    item();
-                }
-            }
-            maker.on = false;
-        }
-
-        private void leave() {
-            deep--;
-            if (deep >= 0) {
-                reader.at = backTo[deep];
-                maker.scope = scopeOutside[deep];
-                maker.forgetFrom(symbolsOutside[deep]);
-            }
+            inside = false;
+            done = false;
         }
 
         private int top() {
-            int found = -1;
+            int found = 0;
             int tops = 0;
             for (int k = 0; k < modules; k++) {
-                int name = tokens.info[moduleName[k]];
+                int name = tokens.info[moduleStart[k] + 1];
                 if (moduleNamed(name) != k) {
-                    faults.refuse(2, tokens.place[moduleName[k]]);
+                    faults.refuse(2, tokens.place[moduleStart[k] + 1]);
                 }
-                if (!instantiated[name]) {
+                if (instantiated[name] == 0) {
                     found = k;
                     tops++;
                 }
@@ -2852,16 +2850,80 @@ public final class SignalTheatre {
             if (tops != 1) {
                 faults.refuse(6, 0);
             }
-            return Math.max(0, found);
+            return found;
         }
 
         private int moduleNamed(int name) {
             for (int k = 0; k < modules; k++) {
-                if (tokens.info[moduleName[k]] == name) {
+                if (tokens.info[moduleStart[k] + 1] == name) {
                     return k;
                 }
             }
             return -1;
+        }
+
+        /** The next ITEM, or the beginning or end of a MODULE. */
+        void item() {
+            int kind = reader.kind();
+            if (!inside) {
+                noteStart();
+                head();
+                inside = true;
+                if (maker.on && deep > 0) {
+                    links();
+                }
+                return;
+            }
+            switch (kind) {
+                case Tokens.ENDMODULE:
+                    leave();
+                    break;
+                case Tokens.WIRE:
+                case Tokens.WAND:
+                case Tokens.WOR:
+                case Tokens.REG:
+                    declaration(kind);
+                    break;
+                case Tokens.INTEGER:
+                    integers();
+                    break;
+                case Tokens.LOCALPARAM:
+                    reader.take(kind);
+                    parameter();
+                    reader.take(';');
+                    break;
+                case Tokens.ASSIGN:
+                    maker.checkRoom(reader.take(kind));
+                    maker.beginLeft();
+                    reader.left(Maker.NETS);
+                    reader.take('=');
+                    reader.choice();
+                    reader.take(';');
+                    maker.assign();
+                    faults.settle();
+                    break;
+                case Tokens.INITIAL:
+                case Tokens.ALWAYS:
+                    maker.checkRoom(reader.take(kind));
+                    int start = maker.here();
+                    reader.statement(0);
+                    faults.settle();
+                    finishProcess(start, kind == Tokens.ALWAYS);
+                    break;
+                default:
+                    if (maker.on) {
+                        instance();
+                    } else {
+                        instanceForm();
+                    }
+                    break;
+            }
+        }
+
+        private void noteStart() {
+            if (!maker.on && modules < MOST_MODULES) {
+                moduleStart[modules] = reader.at;
+            }
         }
 
         /** A MODULE up to its first ITEM. */
@@ -2897,11 +2959,11 @@ public final class SignalTheatre {
             int name = reader.take(Tokens.NAME);
             reader.take('=');
             boolean making = maker.on;
-            maker.on = making && !maker.isGiven(name);
+            maker.turn(making && !maker.isGiven(name));
             int first = reader.at;
             reader.choice();
-            maker.parameter(name, first);
-            maker.on = making;
+            maker.parameter(name, maker.constant(first, true));
+            maker.turn(making);
             faults.settle();
         }
 
@@ -2911,80 +2973,48 @@ public final class SignalTheatre {
                 reader.take(Tokens.OUTPUT);
             }
             boolean variable = !reader.again(Tokens.WIRE) && reader.again(Tokens.REG);
-            form(variable ? Signal.VARIABLE : Signal.WIRE);
+            mould.begin(variable ? Signal.VARIABLE : Signal.WIRE, reader.again(Tokens.SIGNED));
             mould.port = inward ? Signal.INWARD : Signal.OUTWARD;
+            if (reader.sees('[')) {
+                reader.open('[');
+                int first = reader.at;
+                reader.choice();
+                reader.ends(first);
+                reader.close(']');
+                takeWidth(first);
+            }
             int name = reader.take(Tokens.NAME);
             if (variable && inward) {
-                maker.note(3, name);
+                faults.note(3, name);
             }
             maker.declare(name, mould);
         }
 
-        /** 'signed' and RANGE of what is declared next. */
-        private void form(int sort) {
-            mould.sort = sort;
-            mould.port = Signal.NO_PORT;
-            mould.words = 0;
-            mould.signed = reader.again(Tokens.SIGNED);
-            mould.width = 1;
-            mould.low = 0;
-            if (reader.sees('[')) {
-                int first = reader.range();
-                long width = reader.high - reader.low + 1;
-                if (maker.sound && (width < 1 || width > 64)) {
-                    maker.note(4, first);
-                }
-                faults.settle();
-                mould.width = (int) width;
-                mould.low = (int) reader.low;
+        private void takeWidth(int first) {
+            long width = reader.high - reader.low + 1;
+            if (maker.sound && (width < 1 || width > 64)) {
+                faults.note(4, first);
             }
+            faults.settle();
+            mould.width = (int) width;
+            mould.low = (int) reader.low;
         }
 
-        private void item() {
-            switch (reader.kind()) {
-                case Tokens.WIRE:
-                case Tokens.WAND:
-                case Tokens.WOR:
-                case Tokens.REG:
-                    declaration();
-                    break;
-                case Tokens.INTEGER:
-                    integers();
-                    break;
-                case Tokens.LOCALPARAM:
-                    reader.take(Tokens.LOCALPARAM);
-                    parameter();
-                    reader.take(';');
-                    break;
-                case Tokens.ASSIGN:
-                    maker.checkRoom(reader.take(Tokens.ASSIGN));
-                    maker.beginLeft();
-                    reader.left(Maker.NETS);
-                    reader.take('=');
-                    reader.choice();
-                    reader.take(';');
-                    maker.assign();
-                    faults.settle();
-                    break;
-                case Tokens.INITIAL:
-                case Tokens.ALWAYS:
-                    process(reader.kind());
-                    break;
-                default:
-                    instanceForm();
-                    break;
-            }
-        }
-
-        private void declaration() {
-            int kind = reader.kind();
+        private void declaration(int kind) {
             reader.take(kind);
-            form(kind == Tokens.REG ? Signal.VARIABLE : kind - Tokens.WIRE + Signal.WIRE);
+            mould.begin(kind == Tokens.REG ? Signal.VARIABLE : kind - Tokens.WIRE + Signal.WIRE,
+                    reader.again(Tokens.SIGNED));
+            if (reader.sees('[')) {
+                takeWidth(range());
+            }
             for (int k = 0; k < MOST_INPUT; k++) {
                 int name = reader.take(Tokens.NAME);
                 mould.words = 0;
                 if (reader.sees('[')) {
-                    memory(name);
+                    if (mould.sort != Signal.VARIABLE) {
+                        faults.note(3, name);
+                    }
+                    takeWords(range());
                 }
                 maker.declare(name, mould);
                 if (!reader.again(',')) {
@@ -2994,15 +3024,20 @@ public final class SignalTheatre {
             reader.take(';');
         }
 
-        /** The RANGE behind a NAME. */
-        private void memory(int name) {
-            if (mould.sort != Signal.VARIABLE) {
-                maker.note(3, name);
-            }
-            int first = reader.range();
+        /** RANGE; answers its first EXPR's TOKEN. */
+        private int range() {
+            reader.open('[');
+            int first = reader.at;
+            reader.choice();
+            reader.ends(first);
+            reader.close(']');
+            return first;
+        }
+
+        private void takeWords(int first) {
             long words = Math.abs(reader.high - reader.low) + 1;
             if (maker.sound && words > MOST_MEMORY) {
-                maker.note(4, first);
+                faults.note(4, first);
             } else if (maker.sound) {
                 mould.words = (int) words;
                 mould.wordLow = (int) Math.min(reader.high, reader.low);
@@ -3011,12 +3046,8 @@ public final class SignalTheatre {
 
         private void integers() {
             reader.take(Tokens.INTEGER);
-            mould.sort = Signal.VARIABLE;
-            mould.port = Signal.NO_PORT;
-            mould.words = 0;
-            mould.signed = true;
+            mould.begin(Signal.VARIABLE, true);
             mould.width = 32;
-            mould.low = 0;
             for (int k = 0; k < MOST_INPUT; k++) {
                 maker.declare(reader.take(Tokens.NAME), mould);
                 if (!reader.again(',')) {
@@ -3026,26 +3057,66 @@ public final class SignalTheatre {
             reader.take(';');
         }
 
-        private void process(int kind) {
-            maker.checkRoom(reader.take(kind));
-            int start = maker.here();
-            reader.statement(0);
-            if (kind == Tokens.ALWAYS) {
-                maker.emit(Code.JUMP);
+        private void finishProcess(int start, boolean always) {
+            maker.emit(always ? Code.JUMP : Code.OVER);
+            if (always) {
                 maker.emit(start);
-            } else {
-                maker.emit(Code.OVER);
             }
-            faults.settle();
             if (maker.on) {
                 circuit.addProcess(start);
             }
         }
 
+        private void leave() {
+            if (!maker.on) {
+                reader.take(Tokens.ENDMODULE);
+                inside = false;
+                done = reader.sees(Tokens.END);
+                if (modules < MOST_MODULES) {
+                    moduleEnd[modules] = reader.at;
+                    modules++;
+                }
+            } else if (deep == 0) {
+                maker.turn(false);
+                done = true;
+            } else {
+                deep--;
+                reader.at = backTo[deep];
+                maker.scope = scopeOutside[deep];
+                maker.forgetFrom(symbolsOutside[deep]);
+            }
+        }
+
+        /** An instance up to its own NAME; its ports and links come with its MODULE's beginning. */
+        private void instance() {
+            int of = reader.take(Tokens.NAME);
+            int name = reader.sees('#') ? reader.behind(reader.at + 1) : reader.at;
+            int module = moduleNamed(tokens.info[of]);
+            nameInstance(of, name, module);
+            int scope = circuit.addScope(maker.scope, tokens.place[name],
+                    tokens.nameLength[tokens.info[name]]);
+            backTo[deep] = name + 1;
+            scopeOutside[deep] = maker.scope;
+            symbolsOutside[deep] = maker.symbols;
+            deep++;
+            if (reader.again('#')) {
+                reader.open('(');
+                for (int k = 0; k < MOST_INPUT; k++) {
+                    linkParameter(module, scope);
+                    if (!reader.again(',')) {
+                        break;
+                    }
+                }
+                reader.close(')');
+            }
+            maker.scope = scope;
+            reader.at = moduleStart[module];
+            inside = false;
+        }
+
         /** An instance while only the form is looked at. */
         private void instanceForm() {
-            int of = reader.take(Tokens.NAME);
-            instantiated[tokens.info[of]] = true;
+            instantiated[tokens.info[reader.take(Tokens.NAME)]] = 1;
             if (reader.again('#')) {
                 reader.open('(');
                 linkForms();
@@ -3075,60 +3146,25 @@ public final class SignalTheatre {
             }
         }
 
-        /** Its NAME, its parameters, its ports and links; its ITEMS are gone on with. */
-        private void instance() {
-            int of = reader.take(Tokens.NAME);
-            int name = reader.sees('#') ? reader.behind(reader.at + 1) : reader.at;
-            int module = moduleNamed(tokens.info[of]);
-            nameInstance(of, name, module);
-            int outside = maker.scope;
-            int mark = maker.symbols;
-            int inside = circuit.addScope(outside, tokens.place[name],
-                    tokens.nameLength[tokens.info[name]]);
-            if (reader.again('#')) {
-                reader.open('(');
-                for (int k = 0; k < MOST_INPUT; k++) {
-                    linkParameter(module, inside);
-                    if (!reader.again(',')) {
-                        break;
-                    }
-                }
-                reader.close(')');
-            }
-            maker.scope = inside;
-            reader.at = moduleStart[module];
-            head();
-            int items = reader.at;
-            maker.scope = outside;
-            reader.at = name + 1;
-            links(inside);
-            backTo[deep] = reader.at;
-            scopeOutside[deep] = outside;
-            symbolsOutside[deep] = mark;
-            deep++;
-            maker.scope = inside;
-            reader.at = items;
-        }
-
         private void nameInstance(int of, int name, int module) {
             if (module < 0) {
-                maker.note(2, of);
+                faults.note(2, of);
             } else {
                 tokensDone += moduleEnd[module] - moduleStart[module];
             }
             maker.nameInstance(name);
             instances++;
             if (instances > MOST_INSTANCES || deep >= MOST_DEEP || tokensDone > MOST_TOKENS) {
-                maker.note(5, name);
+                faults.note(5, name);
             }
             faults.settle();
         }
 
-        private void linkParameter(int module, int inside) {
+        private void linkParameter(int module, int scope) {
             reader.take('.');
             int name = reader.take(Tokens.NAME);
-            if (!hasParameter(module, tokens.info[name]) || maker.find(name, inside) >= 0) {
-                maker.note(2, name);
+            if (!hasParameter(module, tokens.info[name]) || maker.find(name, ~scope) >= 0) {
+                faults.note(2, name);
             }
             reader.open('(');
             int first = reader.at;
@@ -3140,11 +3176,11 @@ public final class SignalTheatre {
             }
             reader.close(')');
             faults.settle();
-            maker.give(name, inside, empty, value);
+            maker.give(name, scope, empty, value);
         }
 
         private boolean hasParameter(int module, int name) {
-            for (int k = moduleStart[module]; tokens.kind[k] != ';' && k < moduleEnd[module]; k++) {
+            for (int k = moduleStart[module]; k < moduleEnd[module] && tokens.kind[k] != ';'; k++) {
                 if (tokens.kind[k] == Tokens.PARAMETER && tokens.info[k + 1] == name) {
                     return true;
                 }
@@ -3152,37 +3188,38 @@ public final class SignalTheatre {
             return false;
         }
 
-        private void links(int inside) {
+        /** The links of the instance whose ports are known now; they are worked out outside. */
+        private void links() {
+            int items = reader.at;
+            int scope = maker.scope;
+            reader.at = backTo[deep - 1];
+            maker.scope = scopeOutside[deep - 1];
             reader.open('(');
             for (int k = 0; k < MOST_INPUT && !reader.sees(')'); k++) {
-                link(inside);
+                int dot = reader.take('.');
+                int port = maker.port(reader.take(Tokens.NAME), scope);
+                reader.open('(');
+                if (!reader.sees(')')) {
+                    maker.checkRoom(dot);
+                    maker.beginLeft();
+                    if (port >= 0 && circuit.signals[port].port == Signal.OUTWARD) {
+                        reader.outward();
+                        maker.readSignal(port);
+                    } else {
+                        maker.leftPort(port);
+                        reader.choice();
+                    }
+                    maker.assign();
+                }
+                reader.close(')');
                 reader.again(',');
+                faults.settle();
             }
             reader.close(')');
             reader.take(';');
-        }
-
-        private void link(int inside) {
-            int dot = reader.take('.');
-            int name = reader.take(Tokens.NAME);
-            Signal port = maker.port(name, inside);
-            reader.open('(');
-            if (!reader.sees(')')) {
-                maker.checkRoom(dot);
-                maker.beginLeft();
-                if (port == null) {
-                    reader.choice();
-                } else if (port.port == Signal.INWARD) {
-                    maker.leftPort(name, inside);
-                    reader.choice();
-                } else {
-                    reader.outward();
-                    maker.readPort(name, inside);
-                }
-                maker.assign();
-            }
-            reader.close(')');
-            faults.settle();
+            backTo[deep - 1] = reader.at;
+            maker.scope = scope;
+            reader.at = items;
         }
     }
 
@@ -3377,9 +3414,6 @@ public final class SignalTheatre {
         private final int[] digits = new int[24];
         private final Worth worth;
         private Circuit circuit;
-        /** Where the ARGS are that are not written yet. */
-        private int argument;
-        private int argumentsEnd;
 
         Book(Worth someWorth) {
             worth = someWorth;
@@ -3400,15 +3434,32 @@ public final class SignalTheatre {
         /** $display or $write at a line. */
         void show(int line) {
             int[] code = circuit.code.line;
-            argument = line + 3;
-            argumentsEnd = argument + code[line + 2];
-            while (argument < argumentsEnd) {
+            int argument = line + 3;
+            int end = argument + code[line + 2];
+            while (argument < end) {
                 int what = code[argument];
                 argument++;
-                if (what < 0) {
-                    format(read(~what));
-                } else {
+                if (what >= 0) {
                     write(what, 'd', false);
+                    continue;
+                }
+                int length = read(~what);
+                for (int at = 0; at < length; at++) {
+                    int letter = conversion(at, length);
+                    if (letter == 0) {
+                        put(string[at]);
+                        continue;
+                    }
+                    boolean bare = string[at + 1] == '0';
+                    at += bare ? 2 : 1;
+                    if (letter == '%') {
+                        put('%');
+                    } else if (argument == end || code[argument] < 0) {
+                        put('x');
+                    } else {
+                        write(code[argument], letter, bare);
+                        argument++;
+                    }
                 }
             }
             if (code[line + 1] == 1) {
@@ -3431,44 +3482,24 @@ public final class SignalTheatre {
             return length;
         }
 
-        private void format(int length) {
-            for (int at = 0; at < length; at++) {
-                if (string[at] != '%' || at + 1 == length) {
-                    put(string[at]);
-                } else if (string[at + 1] == '%') {
-                    put('%');
-                    at++;
-                } else if (isLetter(string[at + 1])) {
-                    next(string[at + 1], false);
-                    at++;
-                } else if (string[at + 1] == '0' && at + 2 < length && isLetter(string[at + 2])) {
-                    next(string[at + 2], true);
-                    at += 2;
-                } else {
-                    put('%');
-                }
+        /** The letter of the conversion that begins there, % for %%, 0 if none does. */
+        private int conversion(int at, int length) {
+            if (string[at] != '%' || at + 1 == length) {
+                return 0;
             }
-        }
-
-        private static boolean isLetter(int c) {
-            return c > 0 && LETTERS.indexOf((char) c) >= 0;
-        }
-
-        private void next(int letter, boolean bare) {
-            int root = argument < argumentsEnd ? circuit.code.line[argument] : -1;
-            if (root < 0) {
-                put('x');
-            } else {
-                argument++;
-                write(root, letter, bare);
+            if (string[at + 1] == '%') {
+                return '%';
             }
+            int place = string[at + 1] == '0' ? at + 2 : at + 1;
+            boolean known = place < length && LETTERS.indexOf((char) (string[place] & 255)) >= 0;
+            return known ? string[place] : 0;
         }
 
         private void write(int root, int letter, boolean bare) {
             worth.work(circuit, root);
             long ones = worth.ones();
             long unknown = worth.unknown();
-            int shape = circuit.code.own[root];
+            int shape = circuit.code.own[root] & Code.SHAPE;
             switch (letter) {
                 case 'b':
                     groups(ones, unknown, shape & Code.WIDTH, bare ? -1 : 1);
@@ -3494,19 +3525,16 @@ public final class SignalTheatre {
             boolean silent = by < 0;
             for (int low = (width - 1) / step * step; low >= 0; low -= step) {
                 long all = mask(Math.min(step, width - low));
-                int c = group(ones >>> low & all, unknown >>> low & all, all);
+                long group = ones >>> low & all;
+                int c = group < 10 ? (int) ('0' + group) : (int) ('a' + group - 10);
+                if ((unknown >>> low & all) != 0) {
+                    c = unclear(group, unknown >>> low & all, all);
+                }
                 silent = silent && c == '0' && low > 0;
                 if (!silent) {
                     put(c);
                 }
             }
-        }
-
-        private static int group(long ones, long unknown, long all) {
-            if (unknown == 0) {
-                return ones < 10 ? (int) ('0' + ones) : (int) ('a' + ones - 10);
-            }
-            return unclear(ones, unknown, all);
         }
 
         /** The letter for bits with x or z among them. */
@@ -3529,6 +3557,7 @@ public final class SignalTheatre {
             return places;
         }
 
+        /** Of a number without sign. */
         private static long tenth(long number) {
             return (number >>> 1) / 5;
         }
@@ -3567,9 +3596,9 @@ public final class SignalTheatre {
         private static final int MOST_LINES = 1 << 24;
         private static final long MOST_DELAY = 1000000000;
 
-        final Agenda agenda = new Agenda();
-        private final Worth worth = new Worth();
-        final Book book = new Book(worth);
+        final Agenda agenda;
+        private final Worth worth;
+        final Book book;
         private Circuit circuit;
         private Code code;
         /** Of each process: its line, what it assigns after a wait, what it waits for. */
@@ -3589,6 +3618,12 @@ public final class SignalTheatre {
         private int left;
         private int cost;
         private int end;
+
+        Stage(Agenda someAgenda, Worth someWorth, Book someBook) {
+            agenda = someAgenda;
+            worth = someWorth;
+            book = someBook;
+        }
 
         void open(Circuit shown) {
             circuit = shown;
@@ -3633,11 +3668,20 @@ public final class SignalTheatre {
 
         int play(int n) {
             left = n;
-            for (int k = 0; k < n && left > 0 && end == 0; k++) {
-                if (midst < 0 && !begin()) {
+            for (int k = 0; k < MOST_LINES && end == 0; k++) {
+                if (midst < 0) {
+                    if (left == 0 || !begin()) {
+                        break;
+                    }
+                } else if (code.line[line[midst]] != Code.PAY) {
+                    // What costs nothing is done with what was paid before it.
+                    obey(midst, line[midst]);
+                } else if (left > 0) {
+                    pay();
+                    line[midst]++;
+                } else {
                     break;
                 }
-                goOn();
             }
             if (end != 0) {
                 return end;
@@ -3650,7 +3694,7 @@ public final class SignalTheatre {
             cost++;
         }
 
-        /** Takes an EVENT and does it, but for a process, which is to go on then. */
+        /** Takes an EVENT and does it, but for a process, which is to go on then; false: none. */
         private boolean begin() {
             int what = agenda.take();
             worth.now = agenda.now;
@@ -3671,20 +3715,6 @@ public final class SignalTheatre {
             return true;
         }
 
-        /** What costs nothing is done with what was paid before it. */
-        private void goOn() {
-            for (int k = 0; k < MOST_LINES && midst >= 0 && end == 0; k++) {
-                if (code.line[line[midst]] != Code.PAY) {
-                    obey(midst, line[midst]);
-                } else if (left > 0) {
-                    pay();
-                    line[midst]++;
-                } else {
-                    break;
-                }
-            }
-        }
-
         private int operand(int at, int number) {
             return code.line[at + number];
         }
@@ -3703,8 +3733,8 @@ public final class SignalTheatre {
                     heldUnknown[p] = worth.unknown();
                     break;
                 case Code.PUT:
-                    line[p] = at + 3;
-                    assign(operand(at, 1), operand(at, 2), heldOnes[p], heldUnknown[p]);
+                    line[p] = at + 4;
+                    assign(operand(at, 2), operand(at, 3), heldOnes[p], heldUnknown[p]);
                     break;
                 case Code.AFTER:
                     line[p] = at + 5;
@@ -3881,10 +3911,11 @@ public final class SignalTheatre {
                     return index;
                 case Code.BIT:
                     worth.work(circuit, index);
-                    return within(worth.index(index), signal.low, signal.width);
+                    return within(worth.index(0, code.given[index]), signal.low, signal.width);
                 case Code.WORD:
                     worth.work(circuit, index);
-                    int word = within(worth.index(index), signal.wordLow, signal.words);
+                    int word = within(worth.index(0, code.given[index]), signal.wordLow,
+                            signal.words);
                     return word < 0 ? -1 : word * 64;
                 default:
                     return -1;
@@ -3988,20 +4019,6 @@ public final class SignalTheatre {
             }
             circuit.ones[cell] = ones;
             circuit.unknown[cell] = unknown;
-            wake(v, cell, onesBefore, unknownBefore);
-            for (int k = 0; k < SET_LONGS; k++) {
-                long set = circuit.readers[v * SET_LONGS + k];
-                for (int one = 0; one < 64 && set != 0; one++) {
-                    int reader = Agenda.ASSIGNS + k * 64 + Long.numberOfTrailingZeros(set);
-                    set &= set - 1;
-                    if (!agenda.holds(reader)) {
-                        agenda.add(Agenda.ACTIVE, reader);
-                    }
-                }
-            }
-        }
-
-        private void wake(int v, int cell, long onesBefore, long unknownBefore) {
             int kept = 0;
             for (int k = 0; k < waitingCount; k++) {
                 int p = waiting[k];
@@ -4014,6 +4031,16 @@ public final class SignalTheatre {
                 }
             }
             waitingCount = kept;
+            for (int k = 0; k < SET_LONGS; k++) {
+                long set = circuit.readers[v * SET_LONGS + k];
+                for (int one = 0; one < 64 && set != 0; one++) {
+                    int reader = Agenda.ASSIGNS + k * 64 + Long.numberOfTrailingZeros(set);
+                    set &= set - 1;
+                    if (!agenda.holds(reader)) {
+                        agenda.add(Agenda.ACTIVE, reader);
+                    }
+                }
+            }
         }
 
         /** Whether one of the EVENTS at a line is the change that has happened. */
@@ -4021,10 +4048,10 @@ public final class SignalTheatre {
             if (at < 0) {
                 return true;
             }
-            for (int k = 0; k < operand(at, 0); k++) {
-                int edge = operand(at, 1 + 3 * k);
-                int bit = operand(at, 3 + 3 * k);
-                if (operand(at, 2 + 3 * k) != v || bit == -2) {
+            for (int k = at + 1; k < at + 1 + 3 * code.line[at]; k += 3) {
+                int edge = code.line[k];
+                int bit = code.line[k + 2];
+                if (code.line[k + 1] != v || bit == -2) {
                     continue;
                 }
                 if (bit == -1) {
