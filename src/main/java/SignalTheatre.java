@@ -306,12 +306,7 @@ public final class SignalTheatre {
         static final int TIME = 194;
         static final int AS_SIGNED = 195;
         static final int AS_UNSIGNED = 196;
-        private static final String WORDS = """
-                module parameter endmodule input output wire wand wor reg signed integer \
-                localparam assign initial always begin end wait if else case casez default \
-                endcase for while repeat forever or posedge negedge \
-                $display $write $finish $time $signed $unsigned \
-                """;
+        private static final String WORDS = "module parameter endmodule input output wire wand wor reg signed integer localparam assign initial always begin end wait if else case casez default endcase for while repeat forever or posedge negedge $display $write $finish $time $signed $unsigned ";
         static final int MOST_NAMES = MOST_INPUT / 2 + 1;
         private static final int LONGEST_NAME = 64;
         private static final int HEADS = 4096;
@@ -783,6 +778,11 @@ public final class SignalTheatre {
         static final int FOREIGN = 524;
         /** A LEFT that is not there. */
         static final int NOWHERE = 525;
+        // Levels of operators between operands that are worked out alike.
+        static final int JOINING = 2;
+        static final int COMPARING = 6;
+        static final int ORDERING = 7;
+        static final int SHIFTING = 8;
         // What stands in the row of STATEMENTS.
         static final int PAY = 0;
         static final int SET = 1;
@@ -902,12 +902,6 @@ public final class SignalTheatre {
                 lines++;
             }
         }
-
-        // Levels of operators between operands that are worked out alike.
-        static final int JOINING = 2;
-        static final int COMPARING = 6;
-        static final int ORDERING = 7;
-        static final int SHIFTING = 8;
 
         /** How tightly an operator between operands binds, 1 to 10; 0: it is none. */
         static int level(int kind) {
