@@ -856,21 +856,12 @@ public final class SignalTheatre {
             }
         }
 
-        void constant(long someOnes, long someUnknown, int shape) {
+        /** CONSTANT, or CONSTANT_BIT, whose index is the EXPR that begins there. */
+        void constant(int kind, long someOnes, long someUnknown, int from, int shape) {
             if (constants < MOST_CONSTANTS) {
                 ones[constants] = someOnes;
                 unknown[constants] = someUnknown;
-                node(CONSTANT, constants, nodes, shape);
-                constants++;
-            }
-        }
-
-        /** A bit of a parameter; its index is the last EXPR, which begins there. */
-        void constantBit(long someOnes, int from) {
-            if (constants < MOST_CONSTANTS) {
-                ones[constants] = someOnes;
-                unknown[constants] = 0;
-                node(CONSTANT_BIT, constants, from, 1);
+                node(kind, constants, from, shape);
                 constants++;
             }
         }
@@ -1519,8 +1510,7 @@ public final class SignalTheatre {
 
     /** Knows the NAMES and makes code; while it is off, a TEXT is only read for its form. */
     private static final class Maker {
-        // What a NAME is wanted for.
-        static final int READ = 0;
+        // What a LEFT is to be.
         static final int VARIABLES = 1;
         static final int NETS = 2;
         // What a NAME is.
@@ -1724,8 +1714,8 @@ public final class SignalTheatre {
         void number(int token) {
             if (on) {
                 int number = tokens.info[token];
-                code.constant(tokens.numberOnes[number], tokens.numberUnknown[number],
-                        tokens.numberShape[number]);
+                code.constant(Code.CONSTANT, tokens.numberOnes[number],
+                        tokens.numberUnknown[number], code.nodes, tokens.numberShape[number]);
             }
         }
 
@@ -1744,7 +1734,8 @@ public final class SignalTheatre {
                 faults.note(2, token);
                 code.node(Code.UNKNOWN, 0, code.nodes, 1);
             } else if (symbolSort[symbol] == PARAMETER) {
-                code.constant(symbolWorth[symbol] & 0xffffffffL, 0, 32 | Code.SIGNED);
+                code.constant(Code.CONSTANT, symbolWorth[symbol] & 0xffffffffL, 0, code.nodes,
+                        32 | Code.SIGNED);
             } else if (isWhole(symbol)) {
                 readSignal(symbolWorth[symbol]);
             } else {
@@ -1775,7 +1766,7 @@ public final class SignalTheatre {
                 faults.note(2, token);
                 code.node(Code.UNKNOWN, 0, from, 1);
             } else if (symbolSort[symbol] == PARAMETER) {
-                code.constantBit(symbolWorth[symbol] & 0xffffffffL, from);
+                code.constant(Code.CONSTANT_BIT, symbolWorth[symbol] & 0xffffffffL, 0, from, 1);
             } else if (isWhole(symbol)) {
                 code.node(Code.BIT, symbolWorth[symbol], from, 1);
             } else if (symbolSort[symbol] == SIGNAL) {
@@ -1816,7 +1807,7 @@ public final class SignalTheatre {
                 code.node(parameter ? Code.UNKNOWN : Code.FOREIGN, 0, code.nodes, 1);
             } else if (parameter) {
                 int bits = (int) (high - low + 1);
-                code.constant(what >>> part & mask(bits), 0, bits);
+                code.constant(Code.CONSTANT, what >>> part & mask(bits), 0, code.nodes, bits);
             } else {
                 code.node(Code.PART, what * 64 + part, code.nodes, (int) (high - low + 1));
             }
@@ -3378,14 +3369,15 @@ public final class SignalTheatre {
             event[at] = what;
         }
 
-        /** An EVENT that is to set something, the spot and the delay being added later; -1: none. */
-        int plan(int what, int bits, long someOnes, long someUnknown) {
+        /** A new EVENT that is to set something, in no row yet; -1: there are too many. */
+        int plan(int what, int where, int bits, long someOnes, long someUnknown) {
             if (size[FREE] == 0) {
                 return -1;
             }
             int made = first(FREE);
             int slot = made - SETTINGS;
             signal[slot] = what;
+            spot[slot] = where;
             width[slot] = bits;
             ones[slot] = someOnes;
             unknown[slot] = someUnknown;
@@ -3786,13 +3778,11 @@ public final class SignalTheatre {
             long ones = worth.ones();
             long unknown = worth.unknown();
             int other = operand(at, 3);
-            boolean defaulted = false;
             int choice = at + 4;
             for (int k = 0; k < MOST_INPUT; k++) {
                 int labels = operand(choice, 2);
-                if (labels == 0 && !defaulted) {
+                if (labels == 0) {
                     other = operand(choice, 1);
-                    defaulted = true;
                 }
                 for (int label = 0; label < labels; label++) {
                     worth.work(circuit, operand(choice, 3 + label));
@@ -3935,12 +3925,12 @@ public final class SignalTheatre {
             for (int k = operand(at, 2); k < to; k++) {
                 int width = code.leftWidth[k];
                 rest -= width;
-                int made = agenda.plan(code.leftSignal[k], width, ones >>> rest, unknown >>> rest);
+                int made = agenda.plan(code.leftSignal[k], spot(k), width, ones >>> rest,
+                        unknown >>> rest);
                 if (made < 0) {
                     end = 3;
                     break;
                 }
-                agenda.spot[made - Agenda.SETTINGS] = spot(k);
                 if (by == 0) {
                     agenda.add(Agenda.LATER, made);
                 } else {
