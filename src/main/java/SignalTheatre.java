@@ -267,6 +267,8 @@ public final class SignalTheatre {
         static final int XNOR = 142;
         private static final String SIGNS =
                 "=== !== <<< >>> == != <= >= << >> && || ~& ~| ~^ ";
+        /** What can stand behind the first byte of one of these. */
+        private static final String SECOND_SIGNS = "=<>&|^";
         private static final String PLAIN_SIGNS = "()[]{};:,.#@*/%+-<>=!~&|^?";
         // Words follow the order of WORDS.
         static final int MODULE = 160;
@@ -309,7 +311,7 @@ public final class SignalTheatre {
         private static final String WORDS = "module parameter endmodule input output wire wand wor reg signed integer localparam assign initial always begin end wait if else case casez default endcase for while repeat forever or posedge negedge $display $write $finish $time $signed $unsigned ";
         static final int MOST_NAMES = MOST_INPUT / 2 + 1;
         private static final int LONGEST_NAME = 64;
-        private static final int HEADS = 4096;
+        private static final int HEADS = 1024;
         /** What digits are besides their numbers. */
         private static final int DIGIT_X = 16;
         private static final int DIGIT_Z = 17;
@@ -325,6 +327,8 @@ public final class SignalTheatre {
         private final int[] nameNext = new int[MOST_NAMES];
         private final int[] namePlace = new int[MOST_NAMES];
         final int[] nameLength = new int[MOST_NAMES];
+        /** Which of WORDS a NAME is, -1: none, so it is one. */
+        private final int[] nameWord = new int[MOST_NAMES];
         int names;
         /** NUMBERS: their bits, and their shapes. */
         final long[] numberOnes = new long[MOST_NAMES];
@@ -450,11 +454,11 @@ public final class SignalTheatre {
             if (behind - at > LONGEST_NAME) {
                 return ~(at + LONGEST_NAME);
             }
-            int word = listed(WORDS, at, behind - at);
-            if (word >= 0) {
-                add(MODULE + word, at, 0);
+            int name = numberOf(at, behind - at);
+            if (nameWord[name] >= 0) {
+                add(MODULE + nameWord[name], at, 0);
             } else {
-                add(NAME, at, numberOf(at, behind - at));
+                add(NAME, at, name);
             }
             return behind;
         }
@@ -490,7 +494,8 @@ public final class SignalTheatre {
         }
 
         private int sign(int at) {
-            for (int bytes = 3; bytes >= 2; bytes--) {
+            boolean longer = at + 1 < length && SECOND_SIGNS.indexOf((char) byteAt(at + 1)) >= 0;
+            for (int bytes = 3; bytes >= 2 && longer; bytes--) {
                 int found = listed(SIGNS, at, bytes);
                 if (found >= 0) {
                     add(SAME + found, at, 0);
@@ -522,7 +527,7 @@ public final class SignalTheatre {
 
         private boolean isAt(String list, int start, int at, int bytes) {
             for (int k = 0; k < bytes; k++) {
-                if (byteAt(at + k) != list.charAt(start + k)) {
+                if (at + k >= length || text[at + k] != list.charAt(start + k)) {
                     return false;
                 }
             }
@@ -545,6 +550,7 @@ public final class SignalTheatre {
             }
             namePlace[names] = at;
             nameLength[names] = bytes;
+            nameWord[names] = listed(WORDS, at, bytes);
             nameNext[names] = nameHead[head];
             nameHead[head] = names;
             names++;
@@ -1015,7 +1021,6 @@ public final class SignalTheatre {
             scopes = 0;
             assigns = 0;
             processes = 0;
-            Arrays.fill(readers, 0);
         }
 
         boolean isFull() {
@@ -1044,6 +1049,7 @@ public final class SignalTheatre {
             signal.scope = scope;
             signal.place = place;
             signal.bytes = bytes;
+            Arrays.fill(readers, signalCount * SET_LONGS, (signalCount + 1) * SET_LONGS, 0);
             long all = mask(signal.width);
             for (int k = cells; k < cells + size; k++) {
                 ones[k] = signal.sort == Signal.VARIABLE ? all : 0;
@@ -3218,6 +3224,7 @@ public final class SignalTheatre {
         static final int ACTIVE = 0;
         static final int INACTIVE = 1;
         static final int LATER = 2;
+        /** Places of EVENTS that set something and are done. */
         private static final int FREE = 3;
         static final int ASSIGNS = MOST_TASKS;
         static final int SETTINGS = 2 * MOST_TASKS;
@@ -3238,6 +3245,8 @@ public final class SignalTheatre {
         private final int[] event = new int[MOST_FUTURE];
         int future;
         private long ranks;
+        /** How many places of EVENTS that set something have been used. */
+        private int settings;
         final int[] signal = new int[MOST_SETTINGS];
         final int[] spot = new int[MOST_SETTINGS];
         final int[] width = new int[MOST_SETTINGS];
@@ -3248,13 +3257,9 @@ public final class SignalTheatre {
             now = 0;
             future = 0;
             ranks = 0;
-            Arrays.fill(head, LAST);
-            Arrays.fill(tail, LAST);
+            settings = 0;
             Arrays.fill(size, 0);
-            Arrays.fill(next, ABSENT);
-            for (int k = SETTINGS; k < MOST_EVENTS; k++) {
-                add(FREE, k);
-            }
+            Arrays.fill(next, 0, SETTINGS, ABSENT);
             for (int k = 0; k < circuit.assigns + circuit.processes; k++) {
                 add(ACTIVE, circuit.order[k]);
             }
@@ -3371,10 +3376,15 @@ public final class SignalTheatre {
 
         /** A new EVENT that is to set something, in no row yet; -1: there are too many. */
         int plan(int what, int where, int bits, long someOnes, long someUnknown) {
-            if (size[FREE] == 0) {
+            if (size[FREE] == 0 && settings == MOST_SETTINGS) {
                 return -1;
             }
-            int made = first(FREE);
+            int made = SETTINGS + settings;
+            if (size[FREE] > 0) {
+                made = first(FREE);
+            } else {
+                settings++;
+            }
             int slot = made - SETTINGS;
             signal[slot] = what;
             spot[slot] = where;
