@@ -2156,7 +2156,7 @@ public final class SignalTheatre {
         }
 
         /** EXPR. */
-        void choice() {
+        private void choice() {
             int base = waitingCount;
             operand();
             for (int k = 0; k < MOST_INPUT && Code.level(tokens.kind[at]) > 0; k++) {
@@ -2224,7 +2224,7 @@ public final class SignalTheatre {
             }
         }
 
-        void primary() {
+        private void primary() {
             int kind = tokens.kind[at];
             switch (kind) {
                 case Tokens.NUMBER:
@@ -2306,7 +2306,7 @@ public final class SignalTheatre {
         }
 
         /** The first end of a RANGE or part has been read; the ends go to high and low. */
-        void ends(int first) {
+        private void ends(int first) {
             long end = maker.constant(first, false);
             boolean sound = maker.sound;
             int flaw = maker.flaw;
@@ -2318,7 +2318,7 @@ public final class SignalTheatre {
             maker.heedOther(sound, flaw);
         }
 
-        void left(int use) {
+        private void left(int use) {
             if (!sees('{')) {
                 leftName(use);
                 return;
@@ -2354,7 +2354,7 @@ public final class SignalTheatre {
         }
 
         /** The EXPR of a link to an output, which must have the form of a LEFT. */
-        void outward() {
+        private void outward() {
             if (!isLeft()) {
                 faults.note(3, at);
                 choice();
@@ -2384,7 +2384,7 @@ public final class SignalTheatre {
         }
 
         /** STATEMENT; inner is 1 if it stands in another one, else 0. */
-        void statement(int inner) {
+        private void statement(int inner) {
             depth += inner;
             maker.emit(Code.PAY);
             int kind = tokens.kind[at];
