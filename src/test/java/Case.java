@@ -56,6 +56,13 @@ final class Case {
         dueText(call + " throws", got, by.getName());
     }
 
+    /** A refused call must change nothing that another call could tell. */
+    void refusedUnchanged(String call, Class<? extends RuntimeException> by, Call made) {
+        String before = all();
+        refused(call, by, made);
+        dueText("all after " + call, all(), before);
+    }
+
     void bad(String call, Call made) {
         refused(call, IllegalArgumentException.class, made);
     }
@@ -112,6 +119,39 @@ final class Case {
         String got = thrown ? theatre.fault(0) + " at " + theatre.fault(1) : "none";
         dueText("fault of [" + text + "]", got, number + " at " + place);
         return this;
+    }
+
+    /** The last text that is right still, and the first one that is not, after which all stays. */
+    static void edge(String sentence, int number, String right, String wrongMarked) {
+        Case c = of(sentence, right);
+        c.theatre.run(50);
+        String before = c.circuit();
+        c.faulty(number, wrongMarked).count(0, 0);
+        c.dueText("the circuit behind a fault", c.circuit(), before);
+    }
+
+    /** All that calls tell of the circuit. */
+    String circuit() {
+        StringBuilder all = new StringBuilder("time " + theatre.time() + " counts");
+        for (int what = 1; what < 12; what++) {
+            all.append(' ').append(theatre.count(what));
+        }
+        for (int v = 0; v < theatre.count(1); v++) {
+            all.append('\n').append(name(v));
+            for (int what = 0; what < 4; what++) {
+                all.append(' ').append(theatre.told(v, what));
+            }
+            for (int w = 0; w < Math.max(1, theatre.told(v, 2)); w++) {
+                all.append(' ').append(bits(v, w));
+            }
+        }
+        return all.append('\n').append(log()).toString();
+    }
+
+    /** All that calls tell. */
+    String all() {
+        return "fault " + theatre.fault(0) + " at " + theatre.fault(1) + ", input " + theatre.count(0)
+                + "\n" + circuit();
     }
 
     Case run(int n, int want) {

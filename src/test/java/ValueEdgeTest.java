@@ -1,0 +1,313 @@
+import java.math.BigInteger;
+
+/**
+ * Edges of BITS and VALUES: operators at WIDTHS up to 64, with the least and greatest numbers, x and z.
+ *
+ * <p>What is due is worked out here from bits as letters, so in another way than the class does it.
+ */
+public final class ValueEdgeTest {
+    private static final int[] WIDTHS = {1, 2, 31, 32, 33, 63, 64};
+    private static final String[] BINARY = {"+", "-", "*", "/", "%", "&", "|", "^", "~^", "<<", ">>", "<<<", ">>>",
+        "==", "!=", "===", "!==", "<", "<=", ">", ">=", "&&", "||"};
+    private static final String[] UNARY = {"+", "-", "~", "!", "&", "~&", "|", "~|", "^", "~^"};
+
+    public static void main(String[] args) {
+        for (int width : WIDTHS) {
+            for (int signs = 0; signs < 4; signs++) {
+                check(width, (signs & 1) != 0, (signs & 2) != 0);
+            }
+        }
+        indices();
+        braces();
+        Case.close();
+    }
+
+    private static String[] values(int width) {
+        String rest = "0".repeat(width - 1);
+        String ones = "1".repeat(width - 1);
+        return new String[] {rest + "0", rest + "1", "1" + ones, "1" + rest, "0" + ones, "x" + rest, ones + "z",
+            (width > 5 ? "0".repeat(width - 5) + "0111" : rest) + "1", "x".repeat(width), "z".repeat(width)};
+    }
+
+    private static void check(int width, boolean signedA, boolean signedB) {
+        StringBuilder text = new StringBuilder("module t; reg " + (signedA ? "signed " : "") + "[" + (width - 1)
+                + ":0] a; reg " + (signedB ? "signed " : "") + "[" + (width - 1) + ":0] b; ");
+        int nets = 0;
+        for (String op : BINARY) {
+            text.append(net(nets, "a " + op + " b"));
+            nets += 2;
+        }
+        for (String op : UNARY) {
+            text.append(net(nets, op + "a"));
+            nets += 2;
+        }
+        text.append(net(nets, "b ? a : b")).append(net(nets + 2, "1'bx ? a : b")).append("endmodule");
+        for (String a : values(width)) {
+            Case c = null;
+            int calls = 512;
+            for (String b : values(width)) {
+                if (calls + 3 * nets > 512) {
+                    c = Case.of(width + " bits", text.toString());
+                    calls = 10;
+                }
+                calls += 3 * nets;
+                set(c, 0, a);
+                set(c, 1, b);
+                c.run(1000, 2);
+                compare(c, a, b, signedA, signedB);
+            }
+        }
+    }
+
+    /** An EXPR that is assigned to 64 bits, and as it is by itself. */
+    private static String net(int number, String expression) {
+        return "wire [63:0] w" + number + ", w" + (number + 1) + "; assign w" + number + " = " + expression
+                + "; assign w" + (number + 1) + " = {" + expression + "}; ";
+    }
+
+    private static void set(Case c, int v, String bits) {
+        long ones = 0;
+        long unknown = 0;
+        for (char bit : bits.toCharArray()) {
+            ones = ones << 1 | (bit == '1' || bit == 'x' ? 1 : 0);
+            unknown = unknown << 1 | (bit == 'x' || bit == 'z' ? 1 : 0);
+        }
+        c.theatre.set(v, 0, ones, unknown);
+    }
+
+    private static void compare(Case c, String a, String b, boolean signedA, boolean signedB) {
+        int v = 2;
+        int width = a.length();
+        boolean both = signedA && signedB;
+        for (String op : BINARY) {
+            boolean shift = op.startsWith("<<") || op.startsWith(">>");
+            boolean signed = shift ? signedA : both;
+            compare(c, v, a + " " + op + " " + b, binary(op, a, b, 64, signed, both), 64);
+            compare(c, v + 1, "{" + a + " " + op + " " + b + "}", binary(op, a, b, width, signed, both), width);
+            v += 2;
+        }
+        for (String op : UNARY) {
+            compare(c, v, op + a, unary(op, a, 64, signedA), 64);
+            compare(c, v + 1, "{" + op + a + "}", unary(op, a, width, signedA), width);
+            v += 2;
+        }
+        for (int k = 0; k < 2; k++) {
+            char truth = k == 0 ? truth(b) : 'x';
+            compare(c, v, truth + " ? " + a + " : " + b, choice(truth, extend(a, 64, both), extend(b, 64, both)), 64);
+            compare(c, v + 1, "{" + truth + " ? " + a + " : " + b + "}", choice(truth, a, b), width);
+            v += 2;
+        }
+    }
+
+    private static void compare(Case c, int v, String expression, String want, int width) {
+        String due = want.length() == 1 && width > 1 ? "0".repeat(width - 1) + want : want;
+        c.dueText(expression, c.bits(v, 0), "0".repeat(64 - width) + due);
+    }
+
+    private static String extend(String bits, int width, boolean signed) {
+        return String.valueOf(signed ? bits.charAt(0) : '0').repeat(width - bits.length()) + bits;
+    }
+
+    private static boolean isKnown(String bits) {
+        return bits.indexOf('x') < 0 && bits.indexOf('z') < 0;
+    }
+
+    private static BigInteger number(String bits, boolean signed) {
+        BigInteger number = new BigInteger(bits, 2);
+        return signed && bits.charAt(0) == '1' ? number.subtract(BigInteger.ONE.shiftLeft(bits.length())) : number;
+    }
+
+    private static String bits(BigInteger number, int width) {
+        String bits = number.mod(BigInteger.ONE.shiftLeft(width)).toString(2);
+        return "0".repeat(width - bits.length()) + bits;
+    }
+
+    private static char truth(String bits) {
+        return bits.indexOf('1') >= 0 ? '1' : isKnown(bits) ? '0' : 'x';
+    }
+
+    private static char not(char bit) {
+        return bit == '0' ? '1' : bit == '1' ? '0' : 'x';
+    }
+
+    private static char and(char one, char other) {
+        return one == '0' || other == '0' ? '0' : one == '1' && other == '1' ? '1' : 'x';
+    }
+
+    private static char or(char one, char other) {
+        return not(and(not(one), not(other)));
+    }
+
+    private static char xor(char one, char other) {
+        return or(and(one, not(other)), and(not(one), other));
+    }
+
+    private static String binary(String op, String a, String b, int width, boolean signed, boolean both) {
+        String left = extend(a, width, signed);
+        String right = extend(b, width, signed);
+        boolean known = isKnown(a) && isKnown(b);
+        switch (op) {
+            case "+": case "-": case "*": case "/": case "%":
+                return known ? reckon(op, number(left, signed), number(right, signed), width) : "x".repeat(width);
+            case "&": case "|": case "^": case "~^":
+                return mix(op, left, right);
+            case "<<": case "<<<": case ">>": case ">>>":
+                return isKnown(b) ? shift(op, left, number(b, false), signed) : "x".repeat(width);
+            case "===": case "!==":
+                return a.equals(b) == op.equals("===") ? "1" : "0";
+            case "==": case "!=":
+                return equal(op, a, b);
+            case "&&":
+                return "" + and(truth(a), truth(b));
+            case "||":
+                return "" + or(truth(a), truth(b));
+            default:
+                return known ? order(op, number(a, both).compareTo(number(b, both))) : "x";
+        }
+    }
+
+    private static String reckon(String op, BigInteger a, BigInteger b, int width) {
+        switch (op) {
+            case "+":
+                return bits(a.add(b), width);
+            case "-":
+                return bits(a.subtract(b), width);
+            case "*":
+                return bits(a.multiply(b), width);
+            case "/":
+                return b.signum() == 0 ? "x".repeat(width) : bits(a.divide(b), width);
+            default:
+                return b.signum() == 0 ? "x".repeat(width) : bits(a.remainder(b), width);
+        }
+    }
+
+    private static String mix(String op, String a, String b) {
+        StringBuilder mixed = new StringBuilder();
+        for (int k = 0; k < a.length(); k++) {
+            char one = a.charAt(k);
+            char other = b.charAt(k);
+            mixed.append(op.equals("&") ? and(one, other) : op.equals("|") ? or(one, other)
+                    : op.equals("^") ? xor(one, other) : not(xor(one, other)));
+        }
+        return mixed.toString();
+    }
+
+    private static String shift(String op, String a, BigInteger by, boolean signed) {
+        int width = a.length();
+        int places = by.min(BigInteger.valueOf(width)).intValue();
+        if (op.startsWith("<")) {
+            return a.substring(places) + "0".repeat(places);
+        }
+        String fill = op.equals(">>>") && signed ? a.substring(0, 1) : "0";
+        return fill.repeat(places) + a.substring(0, width - places);
+    }
+
+    private static String equal(String op, String a, String b) {
+        boolean odd = false;
+        for (int k = 0; k < a.length(); k++) {
+            char differing = xor(a.charAt(k), b.charAt(k));
+            if (differing == '1') {
+                return op.equals("==") ? "0" : "1";
+            }
+            odd = odd || differing == 'x';
+        }
+        return odd ? "x" : op.equals("==") ? "1" : "0";
+    }
+
+    private static String order(String op, int order) {
+        boolean so = op.equals("<") ? order < 0 : op.equals("<=") ? order <= 0 : op.equals(">") ? order > 0 : order >= 0;
+        return so ? "1" : "0";
+    }
+
+    private static String unary(String op, String a, int width, boolean signed) {
+        String wide = extend(a, width, signed);
+        char all = '1';
+        char some = '0';
+        char odd = '0';
+        for (char bit : a.toCharArray()) {
+            all = and(all, bit);
+            some = or(some, bit);
+            odd = xor(odd, bit);
+        }
+        switch (op) {
+            case "+":
+                return wide;
+            case "-":
+                return isKnown(a) ? bits(number(wide, signed).negate(), width) : "x".repeat(width);
+            case "~":
+                return mix("^", wide, "1".repeat(width));
+            case "!":
+                return "" + not(truth(a));
+            case "&": case "~&":
+                return "" + (op.equals("&") ? all : not(all));
+            case "|": case "~|":
+                return "" + (op.equals("|") ? some : not(some));
+            default:
+                return "" + (op.equals("^") ? odd : not(odd));
+        }
+    }
+
+    private static String choice(char truth, String a, String b) {
+        if (truth != 'x') {
+            return truth == '1' ? a : b;
+        }
+        StringBuilder mixed = new StringBuilder();
+        for (int k = 0; k < a.length(); k++) {
+            char one = a.charAt(k);
+            mixed.append(one == b.charAt(k) && (one == '0' || one == '1') ? one : 'x');
+        }
+        return mixed.toString();
+    }
+
+    /** "NAME[E]: bit E less l of the RANGE, x if not there .. of a MEMORY: that word, all x if not there." */
+    private static void indices() {
+        Case c = Case.of("indices", "module t; reg [63:0] e; reg signed [63:0] s; reg [5:2] a; reg [63:0] b; "
+                + "reg signed [1:-2] d; reg [3:0] m[-1:2], n[4095:0]; wire [3:0] w0, w1, w2, w3, w4, w5, w6; "
+                + "assign w0 = {a[e]}; assign w1 = {b[e]}; assign w2 = {d[s]}; assign w3 = m[s]; assign w4 = n[e]; "
+                + "assign w5 = {d[e]}; assign w6 = m[e]; "
+                + "initial begin a = 4'b1101; b = 1; b[63] = 1; d = 4'b0110; m[-1] = 5; m[0] = 6; m[2] = 9; "
+                + "n[0] = 1; n[4095] = 2; end endmodule");
+        c.run(99, 2);
+        long[] indices = {-3, -2, -1, 0, 1, 2, 3, 5, 6, 63, 64, 4095, 4096, 1L << 32, 2 + (1L << 32), Long.MIN_VALUE,
+            Long.MAX_VALUE};
+        String[] first = {"x", "x", "x", "x", "x", "1", "0", "1", "x", "x", "x", "x", "x", "x", "x", "x", "x"};
+        String[] second = {"x", "x", "x", "1", "0", "0", "0", "0", "0", "1", "x", "x", "x", "x", "x", "x", "x"};
+        String[] third = {"x", "0", "1", "1", "0", "x", "x", "x", "x", "x", "x", "x", "x", "x", "x", "x", "x"};
+        String[] word = {"xxxx", "xxxx", "0101", "0110", "xxxx", "1001", "xxxx", "xxxx", "xxxx", "xxxx", "xxxx", "xxxx",
+            "xxxx", "xxxx", "xxxx", "xxxx", "xxxx"};
+        for (int k = 0; k < indices.length; k++) {
+            c.theatre.set(0, 0, indices[k], 0);
+            c.theatre.set(1, 0, indices[k], 0);
+            c.run(99, 2);
+            c.is(7, "000" + first[k]).is(8, "000" + second[k]).is(9, "000" + third[k]).is(10, word[k]);
+            c.is(11, indices[k] == 0 ? "0001" : indices[k] == 4095 ? "0010" : "xxxx");
+            // Without sign a number below 0 is a great one.
+            c.is(12, "000" + (indices[k] < 0 ? "x" : third[k])).is(13, indices[k] < 0 ? "xxxx" : word[k]);
+        }
+        c.theatre.set(0, 0, 2, 1);
+        c.theatre.set(1, 0, 0, 1L << 63);
+        c.run(99, 2).is(7, "000x").is(8, "000x").is(9, "000x").is(10, "xxxx").is(11, "xxxx");
+    }
+
+    /** "{ }: the sum, of a number n of copies n times that, at most 64." */
+    private static void braces() {
+        String start = "module t; reg [63:0] a; reg [62:0] b; reg c; initial a = ";
+        Case.edge("the sum", 4, start + "{b, c}; endmodule", start + "\u00a7{a, c}; endmodule");
+        Case.edge("copies", 4, start + "{64{c}}; endmodule", start + "\u00a7{65{c}}; endmodule");
+        Case.edge("copies of two", 4, start + "{32{c, c}}; endmodule", start + "\u00a7{32{c, c, c}}; endmodule");
+        Case.edge("copies of 64", 4, start + "{1{a}}; endmodule", start + "\u00a7{2{a}}; endmodule");
+        Case.edge("copies of many", 4, start + "{1{c}}; endmodule", start + "\u00a7{2147483647{c}}; endmodule");
+        Case.edge("in one another", 4, start + "{{32{c}}, {31{c}}, c}; endmodule",
+                start + "\u00a7{{32{c}}, {31{c}}, c, c}; endmodule");
+        Case.edge("in an operand", 4, start + "1 + {b, c}; endmodule", start + "1 + \u00a7{b, c, c}; endmodule");
+        Case.edge("numbers", 4, start + "{1, 2}; endmodule", start + "\u00a7{1, 2, 1'b1}; endmodule");
+        Case.edge("the inner one", 4, start + "|{b, c}; endmodule", start + "|\u00a7{a, c} + {1'b1, |{b, c}}; endmodule");
+        Case.edge("of LEFTS", 4, "module t; reg [62:0] b; reg c, d; initial {b, c} = 1; endmodule",
+                "module t; reg [62:0] b; reg c, d; initial \u00a7{b, c, d} = 1; endmodule");
+        Case.edge("of NETS", 4, "module t; wire [62:0] b; wire c, d; assign {b, c} = 1; endmodule",
+                "module t; wire [62:0] b; wire c, d; assign \u00a7{b, {c, d}} = 1; endmodule");
+        Case.of("64 copies", "module t; reg [63:0] a; initial a = {32{2'b1x}}; endmodule").run(9, 2).is(0, "1x".repeat(32));
+        Case.of("64 bits", "module t; reg [62:0] b; reg c; reg [63:0] d; initial begin {c, b} = 64'h8000000000000001; "
+                + "d = {b, c}; end endmodule").run(9, 2).is(0, "0".repeat(62) + "1").is(1, "1").is(2, "0".repeat(62) + "11");
+    }
+}
