@@ -126,6 +126,8 @@ public final class ConstantEdgeTest {
         String[][] pairs = {{"64'hffffffff_00000005", "0".repeat(29) + "101"}, {"33'h1_80000000", "1" + "0".repeat(31)},
             {"2147483647 + 1", "1" + "0".repeat(31)}, {"-1", "1".repeat(32)}, {"4'hf", "0".repeat(28) + "1111"},
             {"4'shf", "1".repeat(32)}, {"-4'd1", "1".repeat(32)}, {"~1'b0", "1".repeat(32)}, {"{1'b1}", "0".repeat(31) + "1"},
+            {"31'h7fffffff", "0" + "1".repeat(31)}, {"1'b1 << 31", "1" + "0".repeat(31)}, {"31'h7fffffff + 1'b1", "1" + "0".repeat(31)},
+            {"1'b1 << 32", "0".repeat(32)}, {"33'b1 << 32 >> 32", "0".repeat(31) + "1"}, {"16'hffff * 16'hffff >> 31", "0".repeat(31) + "1"},
             {"40'hff_ffff_ffff >> 8", "1".repeat(32)}, {"64'sh8000_0000_0000_0000 >>> 63", "1".repeat(32)}};
         for (String[] pair : pairs) {
             Case.of(pair[0], "module t; localparam P = " + pair[0] + "; initial $write(\"%b\", P); endmodule").run(9, 2)
@@ -164,6 +166,9 @@ public final class ConstantEdgeTest {
         item("a part", 3, "localparam Q = P;", "localparam Q = \u00a71 + a[5:2];");
         item("$time", 3, "localparam Q = P;", "localparam Q = \u00a7$time;");
         item("a word", 3, "reg m[1:0]; localparam Q = P;", "reg m[1:0]; localparam Q = \u00a7-m[0];");
+        item("a MEMORY", 3, "reg m[1:0]; localparam Q = P;", "reg m[1:0]; localparam Q = \u00a71 + m;");
+        item("a MEMORY's part", 3, "reg m[1:0]; localparam Q = P;", "reg m[1:0]; localparam Q = \u00a71 + m[1:0];");
+        item("an instance", 3, "u x(); localparam Q = P; endmodule module u;", "u x(); localparam Q = \u00a71 + x; endmodule module u;");
         item("an index in it", 3, "localparam Q = P[1];", "localparam Q = \u00a7P[v];");
         item("a part's end", 3, "initial v = a[P:2];", "initial v = a[\u00a7v:2];");
         item("a part's second end", 3, "initial v = a[5:P];", "initial v = a[5:\u00a7v];");
@@ -173,6 +178,8 @@ public final class ConstantEdgeTest {
         item("a linked one", 3, "u #(.Q(P)) x(); endmodule module u #(parameter Q = 1);",
                 "u #(.Q(\u00a7P + v)) x(); endmodule module u #(parameter Q = 1);");
         item("not known there", 2, "localparam Q = P; localparam R = Q;", "localparam R = 1 + \u00a7Q; localparam Q = P;");
+        item("a bit of what is not known", 2, "localparam Q = 1 + P[1];", "localparam Q = 1 + \u00a7q[1];");
+        item("a part of what is not known", 2, "localparam Q = 1 + P[2:1];", "localparam Q = 1 + \u00a7q[2:1];");
         item("not its own", 2, "localparam Q = P;", "localparam Q = 1 + \u00a7Q;");
         item("not of another MODULE", 2, "u x(); endmodule module u; localparam Q = 1;", "u x(); endmodule module u; localparam Q = \u00a7P;");
     }

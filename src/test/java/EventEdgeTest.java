@@ -9,6 +9,7 @@ public final class EventEdgeTest {
         awaited();
         starred();
         waits();
+        notBefore();
         settings();
         laterSettings();
         tooMany();
@@ -175,6 +176,28 @@ public final class EventEdgeTest {
         c.count(6, 0);
         c.theatre.set(1, 0, 1, 0);
         c.run(1, 0).run(1, 2).is(2, "1").count(5, cost + 2).count(11, 1);
+    }
+
+    /** What a process waited for before does not wake it any more. */
+    private static void notBefore() {
+        Case c = of("reg a, b, d; reg [1:0] o;", "initial begin @(a) ; wait (b) ; @* o = d; @(negedge d) ; o = 3; end");
+        c.run(99, 2).count(10, 1);
+        c.theatre.set(0, 0, 1, 0);
+        c.run(99, 2).count(10, 1).count(6, 0);
+        c.theatre.set(0, 0, 0, 0);
+        c.count(10, 1).count(6, 0);
+        c.theatre.set(1, 0, 1, 0);
+        c.run(99, 2).count(10, 1);
+        c.theatre.set(0, 0, 1, 0);
+        c.theatre.set(1, 0, 0, 0);
+        c.count(10, 1).count(6, 0);
+        c.theatre.set(2, 0, 1, 0);
+        c.run(99, 2).is(3, "01").count(10, 1);
+        c.theatre.set(0, 0, 0, 0);
+        c.theatre.set(1, 0, 1, 0);
+        c.count(6, 0);
+        c.theatre.set(2, 0, 0, 0);
+        c.run(99, 2).is(3, "11").count(11, 1);
     }
 
     /** "Setting (..): bits that aren't there, or an index with x or z: nothing." */

@@ -171,6 +171,16 @@ public final class LimitEdgeTest {
         }
         Case.of("in other MODULES", "module a #(parameter b = 1) (input c); u u(); v v(); endmodule module u; reg a, b, c, v; "
                 + "endmodule module v; reg a, b, c, u; endmodule").count(1, 9);
+        String[] places = {"a = \u00a7q;", "a = 1 + \u00a7q[0];", "a = 1 + \u00a7q[1:0];", "\u00a7q = 1;", "\u00a7q[0] = 1;", "\u00a7q[1:0] <= 1;", "{a, \u00a7q} = 1;",
+            "#\u00a7q ;", "@(\u00a7q) ;", "@(a or negedge \u00a7q[0]) ;", "wait (\u00a7q) ;", "if (\u00a7q) ;", "case (\u00a7q) 1: ; endcase", "case (1) \u00a7q: ; endcase",
+            "for (\u00a7q = 0; 0; a = 1) ;", "for (a = 0; \u00a7q; a = 1) ;", "for (a = 0; 0; \u00a7q = 1) ;", "for (a = 0; 0; a = \u00a7q) ;", "while (\u00a7q) ;",
+            "repeat (\u00a7q) ;", "$write(\u00a7q);", "a = #\u00a7q 1;", "a = @(\u00a7q) 1;", "a <= #\u00a7q 1;", "a = {\u00a7q{1'b1}};", "a = {1'b1, \u00a7q};",
+            "a = 1 ? \u00a7q : 1;", "a = $signed(\u00a7q);", "a = !\u00a7q;", "a = a[\u00a7q];", "a[\u00a7q] = 1;", "a = a[\u00a7q:0];", "a[0:\u00a7q] = 1;"};
+        for (String place : places) {
+            String right = place.replace("\u00a7q", "b");
+            Case.edge("not known in " + place, 2, "module t; reg [1:0] a; reg [1:0] b; " + (isConstant(place) ? "" : "initial " + right) + " endmodule",
+                    "module t; reg [1:0] a; reg [1:0] b; initial " + place + " endmodule");
+        }
         Case.edge("a MODULE's NAME is none in it", 2, "module t; reg t; endmodule", "module t; initial \u00a7t = 1; endmodule");
         Case.edge("not before it is declared", 2, "module t; reg a; initial a = 1; endmodule", "module t; initial \u00a7a = 1; reg a; endmodule");
         Case.edge("not behind its instance", 2, "module t; u x(); reg b; endmodule module u; reg b; initial b = 1; endmodule",
@@ -186,6 +196,10 @@ public final class LimitEdgeTest {
         Case.edge("a parameter as a port", 2, "module t; u x(.a(1)); endmodule" + inner, "module t; u x(.\u00a7P(1)); endmodule" + inner);
     }
 
+    private static boolean isConstant(String place) {
+        return place.contains("{\u00a7q{") || place.contains("q:0]") || place.contains("[0:");
+    }
+
     private static void kind(String right, String wrongMarked) {
         String start = "module t; reg a, m[1:0]; wire w; integer i; localparam P = 1; ";
         String end = " u z(); endmodule module u(input p, output q, output reg r); endmodule";
@@ -199,6 +213,10 @@ public final class LimitEdgeTest {
         kind("initial m[0] = 1;", "initial \u00a7m = 1;");
         kind("initial m[0] = 1;", "initial \u00a7m[1:0] = 1;");
         kind("initial {a, m[0]} = 1;", "initial {a, \u00a7m} = 1;");
+        kind("initial a = i[0];", "u x(); initial a = \u00a7x[0];");
+        kind("initial a = i[1:0];", "u x(); initial a = \u00a7x[1:0];");
+        kind("initial a = i;", "u x(); initial a = \u00a7x;");
+        kind("initial a = 1;", "u x(); initial \u00a7x = 1;");
         kind("initial @(a) ;", "initial @(a or \u00a7m) ;");
         kind("initial @(a) ;", "initial @(posedge \u00a7m[0]) ;");
         kind("assign w = m[0];", "assign w = \u00a7m;");
@@ -228,6 +246,9 @@ public final class LimitEdgeTest {
         kind("u x(.q(w));", "u x(.q(\u00a7$signed(w)));");
         kind("u x(.q(w));", "u x(.q(\u00a7P));");
         kind("u x(.q(w[P]));", "u x(.q(w[\u00a7i]));");
+        // The first of all NAMES of the circuit is a port, too.
+        Case.edge("an output", 3, "module t; u x(.a(1)); endmodule module u(input a); endmodule",
+                "module t; u x(.a(\u00a71)); endmodule module u(output a); endmodule");
         Case.edge("an input that's a reg", 3, "module t(output reg a); endmodule", "module t(input reg \u00a7a); endmodule");
         Case.edge("an input that's a reg", 3, "module t(input wire a); endmodule", "module t(input reg signed [1:0] \u00a7a); endmodule");
     }

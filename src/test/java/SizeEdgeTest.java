@@ -10,6 +10,8 @@ public final class SizeEdgeTest {
         manyLoops();
         longNames();
         openOperands();
+        farSignals();
+        again();
         oddTexts();
         Case.close();
     }
@@ -118,6 +120,54 @@ public final class SizeEdgeTest {
         Case.of("choices", "module t; reg [31:0] a; initial a = " + (one + "1?").repeat(40) + "7" + (":" + one + "2").repeat(40) + "; endmodule")
                 .run(9, 2);
         Case.of("indices", "module t; reg [31:0] a, b; initial a = " + (one + "b[").repeat(40) + "1" + "]".repeat(40) + "; endmodule").run(9, 2);
+    }
+
+    /** The last VARIABLES and NETS are read, waited for and driven as the first ones are. */
+    private static void farSignals() {
+        Case c = Case.of("far", "module t;" + many("reg [63:0] r#;", 390) + "reg [63:0] a; wire [63:0] b, d; integer n; reg [3:0] m[0:1]; "
+                + "assign b[63:62] = a[1:0]; assign b[61:0] = {a[63:60], a[3:2], 56'd0}; assign d = m[1] + r389[63:60]; "
+                + "initial begin n = 0; wait (a[63:60] == 9) n = 1; @(posedge a[0]) n = 2; @(b[58]) n = 3; end endmodule");
+        c.run(999, 2);
+        c.theatre.set(390, 0, 0x9000000000000006L, 0);
+        c.theatre.set(389, 0, 0xf000000000000000L, 0);
+        c.theatre.set(394, 1, 3, 0);
+        c.run(99, 2).due("n", c.theatre.value(393, 0, 0), 1);
+        c.due("b", c.theatre.value(391, 0, 0), 0xa500000000000000L);
+        c.due("d", c.theatre.value(392, 0, 0), 18);
+        c.theatre.set(390, 0, 0x9000000000000007L, 0);
+        c.run(99, 2).due("n", c.theatre.value(393, 0, 0), 2);
+    }
+
+    /** One TEXT after the other on one object: what an earlier one has used is free again. */
+    private static void again() {
+        Case c = new Case("again");
+        String sum = "module t; reg [31:0] a; initial begin a = " + "1+".repeat(7000) + "1; " + "a[0]=1;".repeat(1000) + "repeat(2)a=a+1;".repeat(500)
+                + " end endmodule";
+        for (int k = 0; k < 8; k++) {
+            c.build(sum);
+            c.run(20000, 2).due("the sum", c.theatre.value(0, 0, 0), 7001 + 1000);
+        }
+        Case d = new Case("EVENTS again");
+        for (int k = 0; k < 4; k++) {
+            d.build("module t; reg a; initial repeat (4000) a <= #1 1; endmodule");
+            d.run(8002, 0).count(9, 4000).count(8, 0);
+            d.build("module t; reg a; initial begin repeat (4000) a <= 1; a = 0; end endmodule");
+            d.run(20000, 2).is(0, "1").count(5, 12004);
+        }
+        Case e = new Case("MEMORIES again");
+        for (int k = 0; k < 6; k++) {
+            e.build("module t; reg m[0:4095], n[0:4095]; integer i; initial begin m[0] = 1; n[4095] = 0; end endmodule");
+            e.is(0, 0, "x").run(9, 2).is(0, 0, "1").is(1, 4095, "0").is(1, 0, "x");
+            e.build("module t;" + many("wire w#;", 400) + "endmodule");
+            e.is(399, "z").is(0, "z");
+        }
+        Case f = new Case("drivers again");
+        for (int k = 0; k < 6; k++) {
+            f.build("module t; wire a, b, c; assign a = 0; assign b = 1; assign c = a; initial @(b) ; endmodule");
+            f.run(99, 2).is(0, "0").is(1, "1").is(2, "0").count(10, 1);
+            f.build("module t; wire a, b, c; reg r; assign a = 1; assign c = r; initial @(a) ; initial wait (r) ; endmodule");
+            f.run(99, 2).is(0, "1").is(1, "z").is(2, "x");
+        }
     }
 
     /** Changed texts, the same ones each time: nothing else than a FAULT is thrown, and its PLACE is in the TEXT. */

@@ -19,6 +19,7 @@ public final class ValueEdgeTest {
         }
         indices();
         braces();
+        operands();
         Case.close();
     }
 
@@ -287,6 +288,25 @@ public final class ValueEdgeTest {
         c.theatre.set(0, 0, 2, 1);
         c.theatre.set(1, 0, 0, 1L << 63);
         c.run(99, 2).is(7, "000x").is(8, "000x").is(9, "000x").is(10, "xxxx").is(11, "xxxx");
+    }
+
+    /** "All other operands are worked out for themselves, with their own L and sign; those of comparisons .." */
+    private static void operands() {
+        String[][] pairs = {{"8'hf0 > $unsigned(4'd2)", "1"}, {"8'hf0 > {2'd1, 2'd1}", "1"}, {"8'hf0 > (4'd15 + 4'd2)", "1"}, {"8'd16 == 4'd15 + 4'd1", "1"},
+            {"4'd0 == {4'd15 + 4'd1}", "1"}, {"-8'sd1 < $signed(4'hf) + 4'sd1", "1"}, {"-8'sd1 < $unsigned(4'd1)", "0"}, {"8'sd1 > -4'sd1", "1"},
+            {"8'sd1 > $signed(4'hf)", "1"}, {"8'd1 > 4'sb1111", "0"}, {"!(4'd15 + 4'd1)", "1"}, {"4'd15 + 4'd1 && 1", "0"}, {"|(4'd15 + 4'd1)", "0"},
+            {"(4'd15 + 4'd1 ? 2'd1 : 2'd2)", "10"}, {"8'd1 << 4'd15 + 4'd1", "00000001"}, {"8'd1 << (4'd15 + 5'd1)", "00000000"},
+            {"4'd8 + 4'd8 >> 1", "0000"}, {"{4'd8 + 4'd8, 1'b1}", "00001"}, {"$signed(4'd8 + 4'd8) + 8'sd0", "00000000"}, {"{2{4'd15 + 4'd1}}", "00000000"},
+            {"4'sb1000 + 8'd0", "00001000"}, {"4'sb1000 + 8'sd0", "11111000"}, {"(4'sb1000 + 4'sd0) + 8'd0", "00001000"}, {"(1 ? 4'sb1000 : 4'sd0) + 8'sd0 == -8", "1"},
+            {"(4'sb1000 >>> 1) + 8'sd0", "11111100"}, {"(4'sb1000 >>> 1) + 8'd0", "00000100"}, {"~4'd0 + 8'd0", "11111111"}, {"-4'd1 + 8'd0", "11111111"},
+            {"!4'd0 + 8'd0", "00000001"}, {"(4'sb1000 < 4'sd0) + 2'd0", "01"}, {"4'sb1000 == 8'sb11111000", "1"}, {"4'sb1000 == 8'b11111000", "0"},
+            {"4'sb1000 === 8'sb11111000", "1"}, {"4'bx === 8'bx", "0"}, {"4'sbx === 8'sbx", "1"}, {"4'bx == 8'b00010000", "0"}, {"4'bx == 8'b00000000", "x"}};
+        for (String[] pair : pairs) {
+            Case.of(pair[0], "module t; initial $write(\"%b\", " + pair[0] + "); endmodule").run(9, 2).logs(pair[1]);
+        }
+        Case.of("$time", "module t; initial #3 $write(\"%b\", 1'bx ? $time : $time); endmodule").run(9, 2).logs("0".repeat(62) + "11");
+        Case.of("assigned", "module t; reg [7:0] a; reg [3:0] b; initial begin a = 4'd15 + 4'd1; b = 8'hff; end endmodule").run(9, 2)
+                .is(0, "00010000").is(1, "1111");
     }
 
     /** "{ }: the sum, of a number n of copies n times that, at most 64." */
