@@ -153,6 +153,8 @@ public final class ConstantEdgeTest {
         Case.edge("32 bits without sign", 4, "module t; reg [32'hffffffff:-1] a; endmodule", "module t; reg [\u00a733'hffffffff:-1] a; endmodule");
         Case.edge("64 bits without sign", 4, "module t; reg [64'hffffffffffffffff:-1] a; endmodule",
                 "module t; reg [\u00a764'h7fffffffffffffff:-1] a; endmodule");
+        Case.edge("the highest bit of a parameter", 4, "module t; localparam P = -1; reg [P[31:31]:P[32] === 1'bx] a; endmodule",
+                "module t; localparam P = -1; reg [P[\u00a732:31]:0] a; endmodule");
         Case.edge("bits of a parameter", 4, "module t; localparam P = 6; reg [P[2:1]:P[0]] a; endmodule",
                 "module t; localparam P = 6; reg [P[\u00a732:1]:P[0]] a; endmodule");
     }

@@ -124,6 +124,20 @@ public final class EventEdgeTest {
         d.run(99, 2).is(1, "x");
         d.theatre.set(0, 0, Long.MIN_VALUE, 0);
         d.run(99, 2).is(1, "1");
+        // What fits one NAME does not fit by another one's change.
+        Case f = of("reg a, b; reg [3:0] d;", "initial begin a = 1; b = 1; d = 0; end initial #1 @(posedge a or negedge b or d[2]) ;");
+        f.run(99, 2).count(10, 1);
+        f.theatre.set(0, 0, 0, 0);
+        f.count(10, 1);
+        f.theatre.set(1, 0, 1, 1);
+        f.count(10, 0).run(99, 2).count(11, 2);
+        Case g = of("reg a, b; reg [3:0] d;", "initial begin a = 0; b = 0; d = 0; end initial #1 @(negedge a or posedge b or d[2]) ;");
+        g.run(99, 2);
+        g.theatre.set(0, 0, 1, 0);
+        g.theatre.set(2, 0, 11, 0);
+        g.count(10, 1);
+        g.theatre.set(2, 0, 15, 0);
+        g.count(10, 0);
         // One process that waits for two things at once goes on once.
         Case e = of("reg a; integer n;", "initial n = 0; always @(a or posedge a or a[0]) n = n + 1;");
         e.run(99, 2);
@@ -309,6 +323,12 @@ public final class EventEdgeTest {
                 }
             }
         }
+        // All get the greatest L, those of later choices, too.
+        of("", "initial case (8'd16) 8'd1: ; 8'd2, 4'd15 + 4'd1: $write(\"y\"); default: $write(\"n\"); endcase").run(9, 2).logs("y");
+        of("", "initial case (8'd16) 1'b1: ; default: ; 4'd8 << 1: $write(\"y\"); endcase").run(9, 2).logs("y");
+        of("", "initial case (4'sb1000) 4'sd1: ; 4'sd2: ; 8'sb11111000: $write(\"y\"); endcase").run(9, 2).logs("y");
+        of("", "initial case (4'sb1000) 4'sd1: ; 4'sd2: ; 8'b00001000: $write(\"y\"); 8'sb11111000: ; endcase").run(9, 2).logs("y");
+        of("", "initial case (4'sb1000) 8'sb11111000: $write(\"n\"); 4'sd2: ; 4'sb1000: $write(\"y\"); 2'd1: ; endcase").run(9, 2).logs("y");
         of("", "initial case (1) 0: $write(\"0\"); endcase").run(9, 2).logs("").count(5, 2);
         of("", "initial case (1) 1: $write(\"1\"); 1: $write(\"2\"); endcase").run(9, 2).logs("1");
         of("", "initial case (1) 0, 1, 2: ; default: $write(\"d\"); endcase").run(9, 2).logs("").count(5, 3);

@@ -55,6 +55,8 @@ public final class LimitEdgeTest {
                 "module t; u x(); u y(); reg \u00a7m[1:1]; endmodule module u; reg m[1:4096]; endmodule");
         Case.edge("4 before 5", 4, "module t; reg m[0:4095], n[4096:1]; endmodule",
                 "module t; reg m[0:4095], k[\u00a70:4096]; endmodule");
+        Case.edge("beside 398 others", 5, "module t; reg m[0:4095]" + many(", r#", 398) + ", n[4096:1]; endmodule",
+                "module t; reg m[0:4095]" + many(", r#", 398) + ", n[4096:1], \u00a7k; endmodule");
         Case c = Case.of("the last words", "module t; reg [63:0] m[0:4095], n[4096:1]; initial begin n[4096] = 7; m[4095] = 6; end endmodule");
         c.run(9, 2).due("word", c.theatre.value(1, 4095, 0), 7);
         c.due("word", c.theatre.value(0, 4095, 0), 6);
@@ -133,6 +135,8 @@ public final class LimitEdgeTest {
         Case.edge("40000", 5, top.replace("\u00a7", "") + body + last, top + body + last.replace("begin ", "begin ;"));
         Case.edge("of the TOP", 5, top.replace("\u00a7", "") + body + last,
                 top.replace("module t;", "module t; initial ;") + body + last);
+        Case.edge("wherever the TOP stands", 5, body + last + " " + top.replace("\u00a7", ""),
+                body + last.replace("begin ", "begin ;") + " " + top);
         Case.edge("not of those that are not flattened", 5, top.replace("\u00a7", "") + body + last
                 + " module x; y z(); endmodule module y; x z(); initial begin " + ";".repeat(5000) + " end endmodule",
                 top + body + last.replace("begin ", "begin ;"));

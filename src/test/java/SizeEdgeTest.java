@@ -11,6 +11,7 @@ public final class SizeEdgeTest {
         longNames();
         openOperands();
         farSignals();
+        eachSignal();
         again();
         oddTexts();
         Case.close();
@@ -138,6 +139,25 @@ public final class SizeEdgeTest {
         c.run(99, 2).due("n", c.theatre.value(393, 0, 0), 2);
     }
 
+    /** Each of 398 VARIABLES wakes the process that waits for it, and no other one, and the ASSIGN that reads it. */
+    private static void eachSignal() {
+        Case c = Case.of("each", "module t;" + many("reg r#;", 398) + many("initial @(r#) ;", 398) + "endmodule");
+        c.run(2000, 2).count(10, 398);
+        Case d = Case.of("each of a wait", "module t;" + many("reg r#;", 398) + many("initial wait (r#) ;", 398) + "endmodule");
+        d.run(2000, 2).count(10, 398);
+        Case e = Case.of("each of a NET", "module t; wire w;" + many("reg r#;", 398)
+                + many("assign w = r#;", 398) + "endmodule");
+        e.run(2000, 2).count(6, 0);
+        for (int v = 0; v < 398; v++) {
+            c.theatre.set(v, 0, 1, 0);
+            c.count(10, 397 - v).count(6, 1).run(9, 2).count(11, v + 1);
+            d.theatre.set(v, 0, 1, 0);
+            d.count(10, 397 - v).count(6, 1).run(9, 2).count(11, v + 1);
+            e.theatre.set(v + 1, 0, 0, 1);
+            e.count(6, 1).run(1, 2).is(0, v < 397 ? "x" : "z");
+        }
+    }
+
     /** One TEXT after the other on one object: what an earlier one has used is free again. */
     private static void again() {
         Case c = new Case("again");
@@ -146,6 +166,11 @@ public final class SizeEdgeTest {
         for (int k = 0; k < 8; k++) {
             c.build(sum);
             c.run(20000, 2).due("the sum", c.theatre.value(0, 0, 0), 7001 + 1000);
+        }
+        Case p = new Case("parameters again");
+        for (int k = 0; k < 12; k++) {
+            p.build("module t;" + many("localparam q#=#;", 1500) + " reg [q9:0] a; endmodule");
+            p.is(0, "x".repeat(10)).faulty(2, "module t;" + many("localparam q#=#;", 1500) + " reg [\u00a7p:0] a; endmodule");
         }
         Case d = new Case("EVENTS again");
         for (int k = 0; k < 4; k++) {

@@ -20,6 +20,8 @@ public final class ValueEdgeTest {
         indices();
         braces();
         operands();
+        levels();
+        choices();
         Case.close();
     }
 
@@ -307,6 +309,42 @@ public final class ValueEdgeTest {
         Case.of("$time", "module t; initial #3 $write(\"%b\", 1'bx ? $time : $time); endmodule").run(9, 2).logs("0".repeat(62) + "11");
         Case.of("assigned", "module t; reg [7:0] a; reg [3:0] b; initial begin a = 4'd15 + 4'd1; b = 8'hff; end endmodule").run(9, 2)
                 .is(0, "00010000").is(1, "1111");
+    }
+
+    /** "levels, the loosest first, each from the left": for each two operators. */
+    private static void levels() {
+        String[] levels = {"||", "&&", "|", "^ ~^", "&", "== != === !==", "< <= > >=", "<< >> <<< >>>", "+ -", "* / %"};
+        for (int one = 0; one < levels.length; one++) {
+            for (int other = 0; other < levels.length; other++) {
+                for (String first : levels[one].split(" ")) {
+                    for (String second : levels[other].split(" ")) {
+                        level(first, second, one >= other);
+                    }
+                }
+            }
+        }
+    }
+
+    /** For all values of a, b and c it must be the same as with the brackets that are due. */
+    private static void level(String first, String second, boolean fromLeft) {
+        String plain = "{a " + first + " b " + second + " c}";
+        String left = "{(a " + first + " b) " + second + " c}";
+        String right = "{a " + first + " (b " + second + " c)}";
+        Case c = Case.of(plain, "module t; reg [2:0] a, b, c; reg l, r, d; initial begin l = 0; r = 0; d = 0; for (a = 0; a < 4; a = a + 1) "
+                + "for (b = 0; b < 4; b = b + 1) for (c = 0; c < 4; c = c + 1) begin if (" + plain + " !== " + left + ") l = 1; if (" + plain
+                + " !== " + right + ") r = 1; if (" + left + " !== " + right + ") d = 1; end end endmodule");
+        c.run(20000, 2).is(fromLeft ? 3 : 4, "0").is(fromLeft ? 4 : 3, c.bits(5, 0));
+    }
+
+    /** ?: is the loosest and from the right, UNARY the tightest. */
+    private static void choices() {
+        String[][] pairs = {{"0 || 1 ? 3'd1 : 3'd2", "001"}, {"0 ? 3'd1 : 0 ? 3'd2 : 3'd3", "011"}, {"1 ? 3'd1 : 1 ? 3'd2 : 3'd3", "001"},
+            {"1 ? 0 ? 3'd4 : 3'd5 : 3'd6", "101"}, {"0 ? 3'd1 : 3'd2 | 3'd4", "110"}, {"1 ? 3'd1 : 3'd2 | 3'd4", "001"}, {"1 ? 3'd1 | 3'd2 : 3'd4", "011"},
+            {"!3'd2 == 1'b0", "1"}, {"-3'd1 * 3'd2", "110"}, {"~3'd1 & 3'd3", "010"}, {"&2'b11 + 1'b1", "0"}, {"-1'b1 ? 2'd1 : 2'd2", "01"},
+            {"~^2'b11 ^ 1'b1", "0"}, {"!!3'd4", "1"}, {"- -3'd3", "011"}, {"~&2'b10 & 1'b0", "0"}, {"^2'b10 + 1'b1", "0"}, {"|2'b10 - 1'b1", "0"}};
+        for (String[] pair : pairs) {
+            Case.of(pair[0], "module t; initial $write(\"%b\", " + pair[0] + "); endmodule").run(9, 2).logs(pair[1]);
+        }
     }
 
     /** "{ }: the sum, of a number n of copies n times that, at most 64." */
