@@ -8,6 +8,7 @@ public final class ConstantEdgeTest {
         unclear();
         numbers();
         parameters();
+        partsOfParameters();
         workedOut();
         noConstants();
         bracesWithFaults();
@@ -137,6 +138,12 @@ public final class ConstantEdgeTest {
             Case.of(pair[0], "module t #(parameter P = " + pair[0] + "); reg [63:0] a; initial a = P; endmodule").run(9, 2)
                     .is(0, pair[1].substring(0, 1).repeat(32) + pair[1]);
         }
+    }
+
+    /** A part of a parameter has its own WIDTH. */
+    private static void partsOfParameters() {
+        Case.of("parts", "module t; localparam P = 32'hf0f0f0ff; initial $write(\"%b|%b|%b|%b|%b\", P[2:1], P[31:28], P[8:7], P[31:0], P[0:0]); endmodule")
+                .run(9, 2).logs("11|1111|01|11110000111100001111000011111111|1");
     }
 
     /** "worked out as if assigned to 32 bits .., and not cut; then they are signed numbers of that WIDTH." */

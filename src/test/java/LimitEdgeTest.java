@@ -275,6 +275,22 @@ public final class LimitEdgeTest {
         c.faulty(4, "module t; reg y; u x(.a(q))" + tail + "1) (input [\u00a764:0] a); initial q = 1; endmodule");
         c.faulty(2, "module t; reg y; u x(.a(\u00a7q))" + tail + "1) (input [63:0] a); initial q = 1; endmodule");
         c.faulty(2, "module t; reg y; u x(.a(y))" + tail + "1) (input [63:0] a); initial \u00a7q = 1; endmodule");
+        // The same with the MODULE before the TOP: the first found has a greater PLACE than the others.
+        String inner = "module u #(parameter P = 1, parameter R = %) (input [%:0] a, input b); initial % = 1; endmodule module t; reg y; ";
+        String[][] firsts = {{"q 64 q", "u #(.P(q)) \u00a7y(.a(q)); endmodule"}, {"q 64 q", "u #(.P(\u00a7q)) x(.a(q)); endmodule"},
+            {"q 64 q", "u #(.P(1), .\u00a7S(1)) x(.a(q)); endmodule"}, {"\u00a7q 64 q", "u x(.a(q)); endmodule"}, {"1 \u00a764 q", "u x(.a(q)); endmodule"},
+            {"1 63 q", "u x(.a(\u00a7q)); endmodule"}, {"1 63 q", "u x(.a(1), .b(\u00a7q)); endmodule"}, {"1 63 q", "u x(.a(1), .\u00a7a(1)); endmodule"},
+            {"1 63 \u00a7q", "u x(.a(1)); assign q = 1; endmodule"}, {"1 63 q", "assign \u00a7q = 1; u x(.a(1)); endmodule"},
+            {"1 63 q", "initial \u00a7q = 1; u x(.a(1)); endmodule"}, {"1 63 q", "wire [\u00a764:0] w; u x(.a(1)); endmodule"},
+            {"1 63 q", "localparam L = \u00a7q; u x(.a(1)); endmodule"}, {"1 63 q", "reg z, \u00a7z; u x(.a(1)); endmodule"},
+            {"1 63 q", "integer \u00a7y; u x(.a(1)); endmodule"}, {"1 63 q", "\u00a7v z(); u x(.a(1)); endmodule"}};
+        for (String[] one : firsts) {
+            String text = inner;
+            for (String part : one[0].split(" ")) {
+                text = text.replaceFirst("%", part);
+            }
+            c.faulty((text + one[1]).contains("\u00a764") ? 4 : 2, text + one[1]);
+        }
         // Of several links the first.
         c.faulty(2, "module t; u #(.P(\u00a7q), .R(1), .P(1)) x()" + tail + "1); endmodule");
         c.faulty(2, "module t; u x(.a(\u00a7q), .b(1))" + tail + "1) (input a); endmodule");

@@ -13,6 +13,7 @@ public final class SizeEdgeTest {
         farSignals();
         eachSignal();
         again();
+        inTurn();
         oddTexts();
         Case.close();
     }
@@ -186,12 +187,34 @@ public final class SizeEdgeTest {
             e.build("module t;" + many("wire w#;", 400) + "endmodule");
             e.is(399, "z").is(0, "z");
         }
-        Case f = new Case("drivers again");
-        for (int k = 0; k < 6; k++) {
-            f.build("module t; wire a, b, c; assign a = 0; assign b = 1; assign c = a; initial @(b) ; endmodule");
-            f.run(99, 2).is(0, "0").is(1, "1").is(2, "0").count(10, 1);
-            f.build("module t; wire a, b, c; reg r; assign a = 1; assign c = r; initial @(a) ; initial wait (r) ; endmodule");
-            f.run(99, 2).is(0, "1").is(1, "z").is(2, "x");
+        Case g = new Case("loops again");
+        for (int k = 0; k < 14; k++) {
+            g.build("module t; integer n; initial begin " + "repeat(1);".repeat(3000) + " n = 7; end endmodule");
+            g.run(20000, 2).is(0, "0".repeat(29) + "111");
+        }
+    }
+
+    /** Three TEXTS in turn, and the same answers as on new objects; some are left before their end. */
+    private static void inTurn() {
+        String[] texts = {
+            "module t; wire a, b, c; reg r; assign a = r; assign b = ~r; assign c = a; initial begin r = 0; #1 r <= 1; #1 r = 0; end "
+                + "always @(b) $write(\"b\"); endmodule",
+            "module t; reg r, a, b; wire c; reg [3:0] m[0:3]; assign c = m[a]; initial begin a = 0; m[0] <= #1 5; wait (c) b = 1; @(r) ; end "
+                + "always #2 a = ~a; endmodule",
+            "module t; wire [3:0] a; reg b, r; integer c; u x(.p(b), .q(a)); initial for (c = 0; c < 9; c = c + 1) b <= #c c; always @* r = b; endmodule "
+                + "module u(input p, output [3:0] q); assign q[1:0] = {2{p}}; assign q[2] = ~p; endmodule"};
+        Case c = new Case("in turn");
+        for (int k = 0; k < 24; k++) {
+            c.build(texts[k % 3]);
+            Case other = Case.of("alone", texts[k % 3]);
+            c.dueText("at first", c.circuit(), other.circuit());
+            for (int n = 1; n < 30 + k; n += 5) {
+                other.run(n, c.theatre.run(n));
+                c.dueText("as alone", c.circuit(), other.circuit());
+                int reg = k % 3 == 0 ? 3 : 1;
+                c.theatre.set(reg, 0, n & 1, 0);
+                other.theatre.set(reg, 0, n & 1, 0);
+            }
         }
     }
 

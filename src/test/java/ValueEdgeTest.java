@@ -19,6 +19,8 @@ public final class ValueEdgeTest {
         }
         indices();
         braces();
+        shifts();
+        narrowIndices();
         operands();
         levels();
         choices();
@@ -290,6 +292,47 @@ public final class ValueEdgeTest {
         c.theatre.set(0, 0, 2, 1);
         c.theatre.set(1, 0, 0, 1L << 63);
         c.run(99, 2).is(7, "000x").is(8, "000x").is(9, "000x").is(10, "xxxx").is(11, "xxxx");
+    }
+
+    /** "Shifts: .. by the right one without sign": by WIDTH - 1, WIDTH, and more. */
+    private static void shifts() {
+        for (int width : WIDTHS) {
+            for (int by : new int[] {0, 1, width - 1, width, width + 1, 63, 64, 65, 127, 128, 255}) {
+                String ones = "1".repeat(width);
+                String value = width + "'h" + new BigInteger(ones, 2).toString(16);
+                int places = Math.min(by, width);
+                String gone = "0".repeat(places);
+                String kept = "1".repeat(width - places);
+                String[][] pairs = {{"<<", kept + gone}, {"<<<", kept + gone}, {">>", gone + kept}, {">>>", gone + kept}};
+                for (String[] pair : pairs) {
+                    Case.of(value + pair[0] + by, "module t; initial $write(\"%b\", " + value + pair[0] + "8'd" + by + "); endmodule").run(9, 2)
+                            .logs(pair[1]);
+                }
+                String signed = value.replace("'h", "'sh");
+                Case.of(signed + by, "module t; initial $write(\"%b%b\", " + signed + ">>>8'd" + by + ", " + signed + ">>8'd" + by + "); endmodule")
+                        .run(9, 2).logs(ones + gone + kept);
+                Case.of("x by " + by, "module t; initial $write(\"%b\", " + width + "'bx<<8'd" + by + "); endmodule").run(9, 2)
+                        .logs("x".repeat(width - places) + gone);
+            }
+        }
+    }
+
+    /** An index is a number of its own WIDTH and sign. */
+    private static void narrowIndices() {
+        for (int width : new int[] {3, 4, 5, 31, 32, 33, 63, 64}) {
+            Case c = Case.of(width + " bits", "module t; reg signed [" + (width - 1) + ":0] s; reg [" + (width - 1) + ":0] u; reg [3:-4] a; reg [3:0] m[-4:3]; "
+                    + "wire v, w; wire [3:0] p, q; assign v = a[s]; assign w = a[u]; assign p = m[s]; assign q = m[u]; "
+                    + "initial begin a = 8'b10110010; m[-4] = 1; m[-1] = 2; m[3] = 3; end endmodule");
+            c.run(99, 2);
+            for (int index = -4; index < 4; index++) {
+                c.theatre.set(0, 0, index, 0);
+                c.theatre.set(1, 0, index, 0);
+                c.run(99, 2);
+                String bit = "" + "10110010".charAt(3 - index);
+                String word = index == -4 ? "0001" : index == -1 ? "0010" : index == 3 ? "0011" : "xxxx";
+                c.is(4, bit).is(5, index < 0 ? "x" : bit).is(6, word).is(7, index < 0 ? "xxxx" : word);
+            }
+        }
     }
 
     /** "All other operands are worked out for themselves, with their own L and sign; those of comparisons .." */
