@@ -178,6 +178,10 @@ public final class ConstantEdgeTest {
         item("a MEMORY", 3, "reg m[1:0]; localparam Q = P;", "reg m[1:0]; localparam Q = \u00a71 + m;");
         item("a MEMORY's part", 3, "reg m[1:0]; localparam Q = P;", "reg m[1:0]; localparam Q = \u00a71 + m[1:0];");
         item("an instance", 3, "u x(); localparam Q = P; endmodule module u;", "u x(); localparam Q = \u00a71 + x; endmodule module u;");
+        item("an instance's bit", 3, "u x(); localparam Q = P; endmodule module u;", "u x(); localparam Q = \u00a71 + x[0]; endmodule module u;");
+        item("an instance's part", 3, "u x(); localparam Q = P; endmodule module u;", "u x(); localparam Q = \u00a71 + x[1:0]; endmodule module u;");
+        item("a part's end in it", 3, "localparam Q = P[1:0];", "localparam Q = \u00a71 + P[v:0];");
+        item("a part's other end in it", 3, "localparam Q = P[1:0];", "localparam Q = \u00a71 + P[1:v];");
         item("an index in it", 3, "localparam Q = P[1];", "localparam Q = \u00a7P[v];");
         item("a part's end", 3, "initial v = a[P:2];", "initial v = a[\u00a7v:2];");
         item("a part's second end", 3, "initial v = a[5:P];", "initial v = a[5:\u00a7v];");

@@ -59,6 +59,8 @@ public final class EventEdgeTest {
             c.run(3, 0).count(7, 0).count(9, 0).is(0, "x");
             c.run(1, 0).count(7, times[k] == 0 ? 1 : 0).count(9, times[k] == 0 ? 0 : 1).count(6, 1).run(99, 2).time(times[k]).is(0, "0").is(1, "1");
         }
+        of("reg [3:0] a, b;", "initial begin a = #1 4'b1x0z; b = @(a) a; end initial begin #2 a = 0; end").run(99, 2).is(0, "0000").is(1, "1x0z");
+        of("reg [3:0] a, b;", "initial {a, b} = #1 8'bxz01_10zx; initial #1 a = 0;").run(99, 2).is(0, "0000").is(1, "10zx");
         // What is assigned is as wide as the LEFT is, and cut then.
         of("reg [3:0] a; reg [2:0] b;", "initial begin b = 7; a = #1 b + 3'd1; end").run(99, 2).is(0, "1000");
         of("reg a; reg [2:0] b;", "initial begin b = 6; a = #1 b; end").run(99, 2).is(0, "0");
@@ -161,6 +163,15 @@ public final class EventEdgeTest {
             c.theatre.set(0, 0, 1, 0);
             c.count(10, wakes[k] ? 0 : 1).count(6, wakes[k] ? 1 : 0);
         }
+        // Not what is read behind its STATEMENT, or before it.
+        Case b = of("reg a, d, e; reg [1:0] o;", "initial begin o = d; @* o = a; o = e; end");
+        b.run(99, 2).count(10, 1);
+        b.theatre.set(1, 0, 1, 0);
+        b.theatre.set(2, 0, 1, 0);
+        b.theatre.set(3, 0, 1, 0);
+        b.count(10, 1).count(6, 0);
+        b.theatre.set(0, 0, 1, 0);
+        b.count(10, 0);
         // Of a MEMORY any word.
         Case c = of("reg m[0:3]; reg o;", "initial @* o = m[0];");
         c.run(99, 2);
@@ -178,6 +189,12 @@ public final class EventEdgeTest {
         for (String one : others) {
             of("reg a;", "initial wait (" + one + ") a = 1;").run(99, 2).is(0, "x").count(5, 2).count(10, 1);
         }
+        Case other = of("reg a, b, d, e;", "initial begin d = b; wait (a) d = b; d = e; end");
+        other.run(99, 2).count(10, 1);
+        other.theatre.set(1, 0, 1, 0);
+        other.theatre.set(2, 0, 1, 0);
+        other.theatre.set(3, 0, 1, 0);
+        other.count(10, 1).count(6, 0);
         Case c = of("reg [3:0] a; reg b, d;", "initial wait (a > 2 && b) d = 1;");
         c.run(99, 2).count(5, 2).count(10, 1);
         int cost = 2;

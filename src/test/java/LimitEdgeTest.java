@@ -291,6 +291,9 @@ public final class LimitEdgeTest {
             }
             c.faulty((text + one[1]).contains("\u00a764") ? 4 : 2, text + one[1]);
         }
+        c.faulty(2, "module u #(parameter R = q, parameter P = 1); endmodule module t; u #(.P(\u00a7z)) x(); endmodule");
+        c.faulty(2, "module u #(parameter R = q, parameter P = 1); endmodule module t; u #(.P(1), .\u00a7S()) x(); endmodule");
+        c.faulty(2, "module u #(parameter R = \u00a7q, parameter P = 1); endmodule module t; u #(.P(1)) x(.a(q)); endmodule");
         // Of several links the first.
         c.faulty(2, "module t; u #(.P(\u00a7q), .R(1), .P(1)) x()" + tail + "1); endmodule");
         c.faulty(2, "module t; u x(.a(\u00a7q), .b(1))" + tail + "1) (input a); endmodule");

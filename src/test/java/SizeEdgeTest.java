@@ -39,10 +39,11 @@ public final class SizeEdgeTest {
         }
     }
 
+    /** A # stands for the number, ## for a #. */
     private static String many(String one, int times) {
         StringBuilder text = new StringBuilder();
         for (int k = 0; k < times; k++) {
-            text.append(one.replace("#", "" + k));
+            text.append(one.replace("##", "\u00b6").replace("#", "" + k).replace("\u00b6", "#"));
         }
         return text.toString();
     }
@@ -83,6 +84,8 @@ public final class SizeEdgeTest {
         String links = many(",.q#(#)", 800);
         Case.of("links", "module t; u #(.p(7)" + links + ") x(); endmodule module u #(parameter p = 0" + many(",parameter q#=p", 800)
                 + "); initial $write(\"%0d\", q799 + p); endmodule").run(9, 2).logs("806");
+        Case.of("of many instances", "module t;" + many("u ##(.p(#)) x#(.a());", 100) + "endmodule module u #(parameter p = 0) (input a); "
+                + "initial if (p == 99) $write(\"%0d\", p); endmodule").run(999, 2).logs("99");
         // In one another, and forgotten behind each.
         StringBuilder chain = new StringBuilder("module t; u0 x(); endmodule ");
         for (int k = 0; k < 20; k++) {
@@ -189,8 +192,24 @@ public final class SizeEdgeTest {
         }
         Case g = new Case("loops again");
         for (int k = 0; k < 14; k++) {
-            g.build("module t; integer n; initial begin " + "repeat(1);".repeat(3000) + " n = 7; end endmodule");
+            g.build("module t; integer n; initial begin " + "repeat(1);".repeat(3000) + " n = 1; repeat (2) repeat (3) n = n + 1; end endmodule");
             g.run(20000, 2).is(0, "0".repeat(29) + "111");
+        }
+        Case h = new Case("LEFTS again");
+        for (int k = 0; k < 8; k++) {
+            h.build("module t; reg a, b; initial begin " + ("{" + "a,".repeat(63) + "a} = 5;").repeat(150) + " {a, b} = 1; end endmodule");
+            h.run(999, 2).is(0, "0").is(1, "1");
+        }
+        Case i = new Case("drivers again");
+        for (int k = 0; k < 6; k++) {
+            if (k % 3 == 0) {
+                i.build("module t; wire [63:0] a, b, c; assign a = -1; assign b = 64'bx; assign c = -1; endmodule");
+                i.run(9, 2).is(0, "1".repeat(64));
+            } else {
+                // Those that have not been worked out yet drive z.
+                i.build("module t; wire [63:0] w; assign w = 0; assign w = 0; assign w = 1; endmodule");
+                i.run(1, 0).is(0, "0".repeat(64)).run(9, 2).is(0, "0".repeat(63) + "x");
+            }
         }
     }
 

@@ -405,6 +405,12 @@ public final class ValueEdgeTest {
         Case.edge("the inner one", 4, start + "|{b, c}; endmodule", start + "|\u00a7{a, c} + {1'b1, |{b, c}}; endmodule");
         Case.edge("of LEFTS", 4, "module t; reg [62:0] b; reg c, d; initial {b, c} = 1; endmodule",
                 "module t; reg [62:0] b; reg c, d; initial \u00a7{b, c, d} = 1; endmodule");
+        Case.edge("of LEFTS in one another", 4, "module t; integer a; reg [15:0] b, c; initial {a, {b, c}} = 1; endmodule",
+                "module t; integer a; reg [15:0] b, c; initial \u00a7{a, {b, c}, b[0]} = 1; endmodule");
+        Case.edge("of the inner LEFTS", 4, "module t; integer a, b; reg c; initial {{a, b}} = 1; endmodule",
+                "module t; integer a, b; reg c; initial \u00a7{{a, b}, c} = 1; endmodule");
+        Case.of("LEFTS in one another", "module t; integer a; reg [15:0] b, c; initial {a, {b, c}} = 64'h0000000100020003; endmodule").run(9, 2)
+                .is(0, "0".repeat(31) + "1").is(1, "0".repeat(14) + "10").is(2, "0".repeat(14) + "11");
         Case.edge("of NETS", 4, "module t; wire [62:0] b; wire c, d; assign {b, c} = 1; endmodule",
                 "module t; wire [62:0] b; wire c, d; assign \u00a7{b, {c, d}} = 1; endmodule");
         Case.of("64 copies", "module t; reg [63:0] a; initial a = {32{2'b1x}}; endmodule").run(9, 2).is(0, "1x".repeat(32));
