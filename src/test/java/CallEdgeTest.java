@@ -61,7 +61,8 @@ public final class CallEdgeTest {
 
     /** Promise 4, in the midst of a run: a FAULT of each kind leaves all, a right TEXT begins anew. */
     private static void build() {
-        String[] wrong = {"", "module", "module t; \u00a7x", "module t; initial a = 1; endmodule", "module t; wire w; initial w = 1; endmodule",
+        String[] wrong = {"", "module", "module t; \u00a7x", "module t; initial a = 1; endmodule",
+                "module t; wire w; initial w = 1; endmodule",
             "module t; reg [64:0] a; endmodule", "module t; u x(); endmodule module u; u y(); endmodule",
             "module t; endmodule module u; endmodule"};
         for (int steps = 1; steps < 22; steps++) {
@@ -123,7 +124,8 @@ public final class CallEdgeTest {
             }
             for (int w : new int[] {words[v], words[v] + 1, -1, Integer.MIN_VALUE, Integer.MAX_VALUE}) {
                 int signal = v;
-                c.refusedUnchanged("value(" + v + ", " + w + ")", NoSuchElementException.class, () -> c.theatre.value(signal, w, 0));
+                c.refusedUnchanged("value(" + v + ", " + w + ")", NoSuchElementException.class, () -> c.theatre.value(signal, w,
+                        0));
                 c.refusedUnchanged("bad before", IllegalArgumentException.class, () -> c.theatre.value(signal, w, 2));
             }
         }
@@ -216,7 +218,8 @@ public final class CallEdgeTest {
     /** Promise 9. */
     private static void told() {
         Case c = Case.of("told", TEXT);
-        int[][] want = {{1, 0, 0, 1, 1}, {1, 0, 0, 0, 1}, {4, 0, 0, 0, 1}, {64, 1, 3, 0, 1}, {2, 0, 0, 1, 1}, {32, 1, 0, 0, 1}, {1, 0, 0, 1, 3},
+        int[][] want = {{1, 0, 0, 1, 1}, {1, 0, 0, 0, 1}, {4, 0, 0, 0, 1}, {64, 1, 3, 0, 1}, {2, 0, 0, 1, 1}, {32, 1, 0, 0, 1},
+                {1, 0, 0, 1, 3},
             {1, 0, 0, 2, 3}, {1, 0, 0, 3, 3}, {1, 0, 0, 0, 3}};
         for (int v = 0; v < want.length; v++) {
             for (int what = 0; what < 5; what++) {
@@ -224,7 +227,8 @@ public final class CallEdgeTest {
             }
             for (int what : new int[] {5, -1, Integer.MAX_VALUE, Integer.MIN_VALUE}) {
                 int signal = v;
-                c.refusedUnchanged("told(" + v + ", " + what + ")", IllegalArgumentException.class, () -> c.theatre.told(signal, what));
+                c.refusedUnchanged("told(" + v + ", " + what + ")", IllegalArgumentException.class, () -> c.theatre.told(signal,
+                        what));
             }
         }
         Case d = Case.of("WIDTHS", "module t; reg [63:0] a; wire [7:7] b; wor signed [0:-63] c; reg d[0:0], e[4095:0]; endmodule");

@@ -15,7 +15,8 @@ public final class CircuitEdgeTest {
 
     /** "FLATTENING goes through its ITEMS in order; at an instance .. its ports .., then its links, in order, then its ITEMS." */
     private static void flattening() {
-        Case c = Case.of("order", "module v(input e); reg f; initial $write(\"v\"); endmodule module t(output z); reg a; initial $write(\"1\"); "
+        Case c = Case.of("order",
+                "module v(input e); reg f; initial $write(\"v\"); endmodule module t(output z); reg a; initial $write(\"1\"); "
                 + "u x(.p(a), .q(z)); reg b; initial $write(\"2\"); v y(); endmodule module u(input p, output q, input r); reg d; "
                 + "initial $write(\"u\"); v w(.e(d)); wire g; endmodule");
         String[] names = {"z", "a", "x.p", "x.q", "x.r", "x.d", "x.w.e", "x.w.f", "x.g", "b", "y.e", "y.f"};
@@ -27,7 +28,8 @@ public final class CircuitEdgeTest {
         // Links are ASSIGNS before those of the instance's own ITEMS, and in their own order.
         Case d = Case.of("links", "module t; wire a, b, c; u x(.p(a), .o(b), .n(c)); assign a = 1; endmodule "
                 + "module u(input p, output n, output o); assign n = 1; assign o = 0; endmodule");
-        String[][] steps = {{"z", "z", "z", "z"}, {"z", "z", "z", "z"}, {"z", "z", "z", "z"}, {"z", "z", "z", "1"}, {"z", "z", "z", "1"}};
+        String[][] steps = {{"z", "z", "z", "z"}, {"z", "z", "z", "z"}, {"z", "z", "z", "z"}, {"z", "z", "z", "1"}, {"z", "z",
+                "z", "1"}};
         for (String[] step : steps) {
             d.theatre.run(1);
             d.is(0, step[0]).is(1, step[1]).is(2, step[2]).is(4, step[3]);
@@ -52,7 +54,8 @@ public final class CircuitEdgeTest {
         width("worked out outside", 7, "module t; localparam A = 2; u #(.A(A)) x();" + inner);
         width("not with those inside", 3, "module t #(parameter B = 1); u #(.A(B), .C(B + B)) x();" + inner);
         width("of the TOP", 13, "module t #(parameter A = 3, parameter B = A * 4); reg [B:0] r; endmodule");
-        width("through two", 9, "module t; v #(.P(2)) x(); endmodule module v #(parameter P = 1); u #(.A(P), .B(P + 2)) y();" + inner);
+        width("through two", 9, "module t; v #(.P(2)) x(); endmodule module v #(parameter P = 1); u #(.A(P), .B(P + 2)) y();"
+                + inner);
         width("in a port", 5, "module t; u #(.P(4)) x(); endmodule module u #(parameter P = 1) (input [P:0] a); endmodule");
         Case c = Case.of("each its own", "module t; u #(.P(1)) x(); u y(); u #(.P(3)) z(); endmodule "
                 + "module u #(parameter P = 2); localparam Q = P * 2; reg [Q:0] r; initial $write(\"%0d\", Q); endmodule");
@@ -61,11 +64,13 @@ public final class CircuitEdgeTest {
 
     /** "A link to an input is an ASSIGN of the EXPR (worked out outside) to the port." */
     private static void inputs() {
-        String[][] pairs = {{"4'b1010", "1010"}, {"5'b11010", "1010"}, {"2'b10", "0010"}, {"2'sb10", "1110"}, {"2'bxz", "00xz"}, {"2'sbz0", "zzz0"},
+        String[][] pairs = {{"4'b1010", "1010"}, {"5'b11010", "1010"}, {"2'b10", "0010"}, {"2'sb10", "1110"}, {"2'bxz", "00xz"},
+                {"2'sbz0", "zzz0"},
             {"a + a", "1110"}, {"{a, a}", "1111"}, {"P", "1110"}, {"m[1]", "0101"}, {"s", "1111"}};
         for (String[] pair : pairs) {
             Case c = Case.of(pair[0], "module t; localparam P = -2; reg [2:0] a; reg [3:0] m[0:1]; reg signed s; "
-                    + "u x(.i(" + pair[0] + ")); initial begin a = 7; s = 1; m[1] = 5; end endmodule module u(input [3:0] i); endmodule");
+                    + "u x(.i(" + pair[0]
+                            + ")); initial begin a = 7; s = 1; m[1] = 5; end endmodule module u(input [3:0] i); endmodule");
             c.run(99, 2).is(3, pair[1]);
         }
         // NAMES inside and outside are not the same.
@@ -73,12 +78,14 @@ public final class CircuitEdgeTest {
                 + "module u(input a, input b); endmodule");
         c.run(99, 2).is(2, "1").is(3, "0");
         // A port can be driven inside, too.
-        Case.of("driven twice", "module t; u x(.a(1'b1)); endmodule module u(input a); assign a = 0; endmodule").run(99, 2).is(0, "x");
+        Case.of("driven twice", "module t; u x(.a(1'b1)); endmodule module u(input a); assign a = 0; endmodule").run(99,
+                2).is(0, "x");
     }
 
     /** "one to an output an ASSIGN of the port to the EXPR, which must have the form of a LEFT .., of NETS." */
     private static void outputs() {
-        String[] links = {"w", "w[3]", "w[2:1]", "{w[0], w[1], w[2], w[3]}", "{v, w[3:1]}", "{{v, v}, {w[0]}}", "w[9]", "{w[9], w[0]}"};
+        String[] links = {"w", "w[3]", "w[2:1]", "{w[0], w[1], w[2], w[3]}", "{v, w[3:1]}", "{{v, v}, {w[0]}}", "w[9]",
+                "{w[9], w[0]}"};
         String[] wants = {"0101", "1zzz", "z01z", "1010", "101z", "zzz1", "zzzz", "zzz1"};
         for (int k = 0; k < links.length; k++) {
             Case c = Case.of(links[k], "module t; wire [3:0] w; wire v; u x(.o(" + links[k] + ")); endmodule "
@@ -95,14 +102,16 @@ public final class CircuitEdgeTest {
     /** "an empty one or none is nothing." */
     private static void noLinks() {
         for (String links : new String[] {"", ".i(), .o()", ".o()", ".i()"}) {
-            Case c = Case.of(links, "module t; u x(" + links + "); endmodule module u(input [1:0] i, output o); assign o = i[0]; endmodule");
+            Case c = Case.of(links, "module t; u x(" + links
+                    + "); endmodule module u(input [1:0] i, output o); assign o = i[0]; endmodule");
             c.count(2, 1).run(99, 2).is(0, "zz").is(1, "z");
         }
     }
 
     /** "VARIABLES ..; all bits x at first. NETS ..; z at first." */
     private static void atFirst() {
-        Case c = Case.of("at first", "module t(input a, output b, output reg c, input wire [1:0] d); reg [63:0] e; integer f; reg [1:0] g[0:1]; "
+        Case c = Case.of("at first",
+                "module t(input a, output b, output reg c, input wire [1:0] d); reg [63:0] e; integer f; reg [1:0] g[0:1]; "
                 + "wire h; wand [2:0] i; wor j; assign h = 1; initial c = 1; endmodule");
         String[] want = {"z", "z", "x", "zz", "x".repeat(64), "x".repeat(32), "xx", "z", "zzz", "z"};
         for (int v = 0; v < want.length; v++) {
@@ -141,7 +150,8 @@ public final class CircuitEdgeTest {
                 three.append(bits.charAt(k % 4));
                 want.append(resolved(kind, "" + bits.charAt(k / 16) + bits.charAt(k / 4 % 4) + bits.charAt(k % 4)));
             }
-            Case.of(kind, "module t; " + kind + " [63:0] w; assign w = 64'b" + one + "; assign w = 64'b" + two + "; assign w = 64'b" + three
+            Case.of(kind, "module t; " + kind + " [63:0] w; assign w = 64'b" + one + "; assign w = 64'b" + two
+                    + "; assign w = 64'b" + three
                     + "; endmodule").run(9, 2).is(0, want.toString());
         }
     }
@@ -149,7 +159,8 @@ public final class CircuitEdgeTest {
     /** As many as there may be. */
     private static void manyDrivers() {
         for (String kind : new String[] {"wire", "wand", "wor"}) {
-            String text = "module t; " + kind + " w; reg a; " + "assign w = 1'bz; ".repeat(398) + "assign w = a; assign w = 1; endmodule";
+            String text = "module t; " + kind + " w; reg a; " + "assign w = 1'bz; ".repeat(398)
+                    + "assign w = a; assign w = 1; endmodule";
             Case c = Case.of(kind, text).run(999, 2).is(0, kind.equals("wor") ? "1" : "x");
             c.theatre.set(1, 0, 0, 0);
             c.run(9, 2).is(0, kind.equals("wire") ? "x" : kind.equals("wor") ? "1" : "0");
@@ -164,9 +175,12 @@ public final class CircuitEdgeTest {
     private static void partsOfNets() {
         Case.of("parts", "module t; wire [5:2] w; assign w[5] = 1; assign w[4:3] = 2'b0x; assign w[6] = 1; assign w[1] = 1; endmodule")
                 .run(9, 2).is(0, "10xz");
-        Case.of("the same bits", "module t; wire [3:0] w; assign w[3:1] = 3'b101; assign w[2:0] = 3'b011; endmodule").run(9, 2).is(0, "1011");
-        Case.of("of 64", "module t; wire [63:0] w; assign w[63] = 1; assign w[62:0] = -1; endmodule").run(9, 2).is(0, "1".repeat(64));
-        Case.of("from the left", "module t; wire a, b; reg r; assign {a, b} = {2{r}}; initial begin #1 r = 1; end always @(a) $write(\"a%b\", b); "
+        Case.of("the same bits", "module t; wire [3:0] w; assign w[3:1] = 3'b101; assign w[2:0] = 3'b011; endmodule").run(9,
+                2).is(0, "1011");
+        Case.of("of 64", "module t; wire [63:0] w; assign w[63] = 1; assign w[62:0] = -1; endmodule").run(9, 2).is(0,
+                "1".repeat(64));
+        Case.of("from the left",
+                "module t; wire a, b; reg r; assign {a, b} = {2{r}}; initial begin #1 r = 1; end always @(a) $write(\"a%b\", b); "
                 + "always @(b) $write(\"b%b\", a); endmodule").run(99, 2).logs("a1b1");
         Case.of("no change", "module t; wire w; reg r; assign w = r; initial #1 r = 1'bx; always @(w) $write(\"w\"); initial #2 r = 0; endmodule")
                 .run(99, 2).logs("w");

@@ -117,7 +117,8 @@ public final class ConstantEdgeTest {
         item("part", 4, "initial v = a[64'd5:2];", "initial v = a[\u00a764'd4294967301:2];");
         item("EVENT", 4, "initial @(a[33'd2147483647]) ;", "initial @(a[\u00a733'd2147483648]) ;");
         item("NET's bit", 4, "assign w[33'd2147483647] = 1;", "assign w[\u00a733'd2147483648] = 1;");
-        item("but for parameters", 4, "localparam Q = 64'd4294967299; reg [Q:3] b;", "localparam Q = 64'd4294967299; reg [\u00a764'd4294967299:3] b;");
+        item("but for parameters", 4, "localparam Q = 64'd4294967299; reg [Q:3] b;",
+                "localparam Q = 64'd4294967299; reg [\u00a764'd4294967299:3] b;");
         // Not in a VALUE's index, which is no CONSTANT.
         item("no CONSTANT", 4, "initial v = a[33'd2147483648];", "initial v = a[\u00a733'd2147483648:2];");
     }
@@ -127,8 +128,10 @@ public final class ConstantEdgeTest {
         String[][] pairs = {{"64'hffffffff_00000005", "0".repeat(29) + "101"}, {"33'h1_80000000", "1" + "0".repeat(31)},
             {"2147483647 + 1", "1" + "0".repeat(31)}, {"-1", "1".repeat(32)}, {"4'hf", "0".repeat(28) + "1111"},
             {"4'shf", "1".repeat(32)}, {"-4'd1", "1".repeat(32)}, {"~1'b0", "1".repeat(32)}, {"{1'b1}", "0".repeat(31) + "1"},
-            {"31'h7fffffff", "0" + "1".repeat(31)}, {"1'b1 << 31", "1" + "0".repeat(31)}, {"31'h7fffffff + 1'b1", "1" + "0".repeat(31)},
-            {"1'b1 << 32", "0".repeat(32)}, {"33'b1 << 32 >> 32", "0".repeat(31) + "1"}, {"16'hffff * 16'hffff >> 31", "0".repeat(31) + "1"},
+            {"31'h7fffffff", "0" + "1".repeat(31)}, {"1'b1 << 31", "1" + "0".repeat(31)}, {"31'h7fffffff + 1'b1", "1"
+                    + "0".repeat(31)},
+            {"1'b1 << 32", "0".repeat(32)}, {"33'b1 << 32 >> 32", "0".repeat(31) + "1"}, {"16'hffff * 16'hffff >> 31",
+                    "0".repeat(31) + "1"},
             {"40'hff_ffff_ffff >> 8", "1".repeat(32)}, {"64'sh8000_0000_0000_0000 >>> 63", "1".repeat(32)}};
         for (String[] pair : pairs) {
             Case.of(pair[0], "module t; localparam P = " + pair[0] + "; initial $write(\"%b\", P); endmodule").run(9, 2)
@@ -157,7 +160,8 @@ public final class ConstantEdgeTest {
             Case c = Case.of(ends[k], "module t; reg [" + ends[k] + ":0] a; endmodule");
             c.due("WIDTH", c.theatre.told(0, 0), widths[k]);
         }
-        Case.edge("32 bits without sign", 4, "module t; reg [32'hffffffff:-1] a; endmodule", "module t; reg [\u00a733'hffffffff:-1] a; endmodule");
+        Case.edge("32 bits without sign", 4, "module t; reg [32'hffffffff:-1] a; endmodule",
+                "module t; reg [\u00a733'hffffffff:-1] a; endmodule");
         Case.edge("64 bits without sign", 4, "module t; reg [64'hffffffffffffffff:-1] a; endmodule",
                 "module t; reg [\u00a764'h7fffffffffffffff:-1] a; endmodule");
         Case.edge("the highest bit of a parameter", 4, "module t; localparam P = -1; reg [P[31:31]:P[32] === 1'bx] a; endmodule",
@@ -177,9 +181,12 @@ public final class ConstantEdgeTest {
         item("a word", 3, "reg m[1:0]; localparam Q = P;", "reg m[1:0]; localparam Q = \u00a7-m[0];");
         item("a MEMORY", 3, "reg m[1:0]; localparam Q = P;", "reg m[1:0]; localparam Q = \u00a71 + m;");
         item("a MEMORY's part", 3, "reg m[1:0]; localparam Q = P;", "reg m[1:0]; localparam Q = \u00a71 + m[1:0];");
-        item("an instance", 3, "u x(); localparam Q = P; endmodule module u;", "u x(); localparam Q = \u00a71 + x; endmodule module u;");
-        item("an instance's bit", 3, "u x(); localparam Q = P; endmodule module u;", "u x(); localparam Q = \u00a71 + x[0]; endmodule module u;");
-        item("an instance's part", 3, "u x(); localparam Q = P; endmodule module u;", "u x(); localparam Q = \u00a71 + x[1:0]; endmodule module u;");
+        item("an instance", 3, "u x(); localparam Q = P; endmodule module u;",
+                "u x(); localparam Q = \u00a71 + x; endmodule module u;");
+        item("an instance's bit", 3, "u x(); localparam Q = P; endmodule module u;",
+                "u x(); localparam Q = \u00a71 + x[0]; endmodule module u;");
+        item("an instance's part", 3, "u x(); localparam Q = P; endmodule module u;",
+                "u x(); localparam Q = \u00a71 + x[1:0]; endmodule module u;");
         item("a part's end in it", 3, "localparam Q = P[1:0];", "localparam Q = \u00a71 + P[v:0];");
         item("a part's other end in it", 3, "localparam Q = P[1:0];", "localparam Q = \u00a71 + P[1:v];");
         item("an index in it", 3, "localparam Q = P[1];", "localparam Q = \u00a7P[v];");
@@ -194,7 +201,8 @@ public final class ConstantEdgeTest {
         item("a bit of what is not known", 2, "localparam Q = 1 + P[1];", "localparam Q = 1 + \u00a7q[1];");
         item("a part of what is not known", 2, "localparam Q = 1 + P[2:1];", "localparam Q = 1 + \u00a7q[2:1];");
         item("not its own", 2, "localparam Q = P;", "localparam Q = 1 + \u00a7Q;");
-        item("not of another MODULE", 2, "u x(); endmodule module u; localparam Q = 1;", "u x(); endmodule module u; localparam Q = \u00a7P;");
+        item("not of another MODULE", 2, "u x(); endmodule module u; localparam Q = 1;",
+                "u x(); endmodule module u; localparam Q = \u00a7P;");
     }
 
     /** "{ } above 64 (if none of their parts has a fault 2, 3, or of a CONSTANT)." */

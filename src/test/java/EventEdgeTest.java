@@ -57,9 +57,11 @@ public final class EventEdgeTest {
         for (int k = 0; k < delays.length; k++) {
             Case c = of("reg a, b;", "initial begin b = 0; a = " + delays[k] + " b; end initial b = 1;");
             c.run(3, 0).count(7, 0).count(9, 0).is(0, "x");
-            c.run(1, 0).count(7, times[k] == 0 ? 1 : 0).count(9, times[k] == 0 ? 0 : 1).count(6, 1).run(99, 2).time(times[k]).is(0, "0").is(1, "1");
+            c.run(1, 0).count(7, times[k] == 0 ? 1 : 0).count(9, times[k] == 0 ? 0 : 1).count(6, 1).run(99,
+                    2).time(times[k]).is(0, "0").is(1, "1");
         }
-        of("reg [3:0] a, b;", "initial begin a = #1 4'b1x0z; b = @(a) a; end initial begin #2 a = 0; end").run(99, 2).is(0, "0000").is(1, "1x0z");
+        of("reg [3:0] a, b;", "initial begin a = #1 4'b1x0z; b = @(a) a; end initial begin #2 a = 0; end").run(99, 2).is(0,
+                "0000").is(1, "1x0z");
         of("reg [3:0] a, b;", "initial {a, b} = #1 8'bxz01_10zx; initial #1 a = 0;").run(99, 2).is(0, "0000").is(1, "10zx");
         // What is assigned is as wide as the LEFT is, and cut then.
         of("reg [3:0] a; reg [2:0] b;", "initial begin b = 7; a = #1 b + 3'd1; end").run(99, 2).is(0, "1000");
@@ -127,13 +129,15 @@ public final class EventEdgeTest {
         d.theatre.set(0, 0, Long.MIN_VALUE, 0);
         d.run(99, 2).is(1, "1");
         // What fits one NAME does not fit by another one's change.
-        Case f = of("reg a, b; reg [3:0] d;", "initial begin a = 1; b = 1; d = 0; end initial #1 @(posedge a or negedge b or d[2]) ;");
+        Case f = of("reg a, b; reg [3:0] d;",
+                "initial begin a = 1; b = 1; d = 0; end initial #1 @(posedge a or negedge b or d[2]) ;");
         f.run(99, 2).count(10, 1);
         f.theatre.set(0, 0, 0, 0);
         f.count(10, 1);
         f.theatre.set(1, 0, 1, 1);
         f.count(10, 0).run(99, 2).count(11, 2);
-        Case g = of("reg a, b; reg [3:0] d;", "initial begin a = 0; b = 0; d = 0; end initial #1 @(negedge a or posedge b or d[2]) ;");
+        Case g = of("reg a, b; reg [3:0] d;",
+                "initial begin a = 0; b = 0; d = 0; end initial #1 @(negedge a or posedge b or d[2]) ;");
         g.run(99, 2);
         g.theatre.set(0, 0, 1, 0);
         g.theatre.set(2, 0, 11, 0);
@@ -149,13 +153,16 @@ public final class EventEdgeTest {
 
     /** "@*: for any change of a NAME that's read in its STATEMENT (all NAMES in EXPRS; of LEFTS just indices)." */
     private static void starred() {
-        String[] statements = {"o = 0;", "o = a;", "a = o;", "if (a) ;", "o[a] = 1;", "{o[0], o[a]} = 1;", "a[0] = 1;", "a[1:0] = 1;",
+        String[] statements = {"o = 0;", "o = a;", "a = o;", "if (a) ;", "o[a] = 1;", "{o[0], o[a]} = 1;", "a[0] = 1;",
+                "a[1:0] = 1;",
             "case (a) 0: ; endcase", "case (0) 1, a: ; endcase", "for (a = 0; 0; a = 1) ;", "for (o = a; 0; o = 1) ;",
             "for (o = 0; a > 9; o = 1) ;", "for (o = 0; 0; o = a) ;", "while (a > 9) ;", "repeat (a) ;", "wait (a) ;", "#a ;",
             "o = #a 1;", "o <= #a 1;", "o <= a;", "o[a] <= 1;", "$write(\"%c\", a);", "$write(\"a\");", "@(a) ;", "o = @(a) 1;",
-            "begin begin ; if (0) o = -a; end end", "if (0) ; else o = {2{a}};", "o = m[a];", "m[a] = 1;", "o = a[0];", "o = a[1:0];",
+            "begin begin ; if (0) o = -a; end end", "if (0) ; else o = {2{a}};", "o = m[a];", "m[a] = 1;", "o = a[0];",
+                    "o = a[1:0];",
             "@* o = a;", "o = $signed(a) + $time;", "o = 1 ? 2 : a;", "forever #1 o = a;"};
-        boolean[] wakes = {false, true, false, true, true, true, false, false, true, true, false, true, true, true, true, true, true,
+        boolean[] wakes = {false, true, false, true, true, true, false, false, true, true, false, true, true, true, true, true,
+                true,
             true, true, true, true, true, true, false, false, false, true, true, true, true, true, true, true, true, true, true};
         for (int k = 0; k < statements.length; k++) {
             Case c = of("reg [1:0] a; reg [3:0] o; reg m[0:3];", "initial @* " + statements[k]);
@@ -233,9 +240,11 @@ public final class EventEdgeTest {
 
     /** "Setting (..): bits that aren't there, or an index with x or z: nothing." */
     private static void settings() {
-        String[] lefts = {"a[2]", "a[5]", "a[1]", "a[6]", "a[-1]", "a[2'b1x]", "a[32'hffffffff]", "a[64'h100000002]", "a[64'h8000000000000002]",
+        String[] lefts = {"a[2]", "a[5]", "a[1]", "a[6]", "a[-1]", "a[2'b1x]", "a[32'hffffffff]", "a[64'h100000002]",
+                "a[64'h8000000000000002]",
             "a[5:2]", "a[3:3]", "{a[9], a[2]}", "{a[2], a[9]}", "{a[3], a[1'bz], a[2]}"};
-        String[] wants = {"0001", "1000", "0000", "0000", "0000", "0000", "0000", "0000", "0000", "0111", "0010", "0001", "0001", "0011"};
+        String[] wants = {"0001", "1000", "0000", "0000", "0000", "0000", "0000", "0000", "0000", "0111", "0010", "0001",
+                "0001", "0011"};
         for (int k = 0; k < lefts.length; k++) {
             of("reg [5:2] a;", "initial begin a = 0; " + lefts[k] + " = 7; end").run(99, 2).is(0, wants[k]);
             of("reg [5:2] a;", "initial begin a = 0; " + lefts[k] + " <= 7; end").run(99, 2).is(0, wants[k]);
@@ -252,7 +261,8 @@ public final class EventEdgeTest {
         // "each one's index being worked out just before it's set"
         of("reg [1:0] i; reg [3:0] a;", "initial begin a = 0; i = 0; {i, a[i], i, a[i]} = 6'b01_1_10_1; end")
                 .run(99, 2).is(1, "0110").is(0, "10");
-        of("reg [1:0] i; reg [3:0] a;", "initial begin a = 0; i = 3; {a[i], i} = 3'b1_00; end").run(99, 2).is(1, "1000").is(0, "00");
+        of("reg [1:0] i; reg [3:0] a;", "initial begin a = 0; i = 3; {a[i], i} = 3'b1_00; end").run(99, 2).is(1, "1000").is(0,
+                "00");
         // A value that is the same as before is no CHANGE.
         Case c = of("reg a; reg [1:0] b;", "initial begin a = 1'bx; b[1] = 1'bx; b[7] = 0; end always @(a or b) $write(\"c\");");
         c.run(99, 2).logs("").count(10, 1);
@@ -260,7 +270,8 @@ public final class EventEdgeTest {
 
     /** "A <= R: R and A's indices are worked out; an EVENT for each NAME in A, from the left." */
     private static void laterSettings() {
-        of("reg [1:0] i; reg [3:0] a;", "initial begin a = 0; i = 1; {i, a[i]} <= 3'b111; i = 2; end").run(99, 2).is(1, "0010").is(0, "11");
+        of("reg [1:0] i; reg [3:0] a;", "initial begin a = 0; i = 1; {i, a[i]} <= 3'b111; i = 2; end").run(99, 2).is(1,
+                "0010").is(0, "11");
         Case c = of("reg a, b; reg [1:0] d;", "initial {a, d[5], b, d[1:0]} <= 5'b1_1_0_10;");
         c.run(2, 0).count(8, 4).run(1, 0).is(0, "1").count(6, 3).run(1, 0).is(2, "xx").run(1, 0).is(1, "0").run(1, 2).is(2, "10");
         c.count(5, 6);
@@ -286,7 +297,8 @@ public final class EventEdgeTest {
         d.run(5, 2).is(0, "1");
         // LATER and FUTURE together; those that are done wait no more.
         of("reg a;", "initial begin repeat (2000) a <= 1; repeat (2000) a <= #1 1; end").run(20000, 2).time(1);
-        of("reg a;", "initial begin repeat (2000) a <= 1; repeat (2001) a <= #1 1; end").run(20000, 3).count(8, 2000).count(9, 2000);
+        of("reg a;", "initial begin repeat (2000) a <= 1; repeat (2001) a <= #1 1; end").run(20000, 3).count(8, 2000).count(9,
+                2000);
         of("reg a;", "initial begin repeat (4000) a <= 1; #0 a <= 1; end").run(20000, 3).count(8, 4000);
         of("reg a;", "initial begin repeat (4000) a <= 1; #1 a <= 1; end").run(20000, 2).time(1);
         // Those in ACTIVE wait, too, but for the one that is being done.
@@ -333,26 +345,31 @@ public final class EventEdgeTest {
             for (char other : bits.toCharArray()) {
                 for (String word : new String[] {"case", "casez"}) {
                     boolean fits = one == other || word.equals("casez") && (one == 'z' || other == 'z');
-                    of("", "initial " + word + " (2'b1" + one + ") 2'b1" + other + ": $write(\"1\"); default: $write(\"0\"); endcase")
+                    of("", "initial " + word + " (2'b1" + one + ") 2'b1" + other
+                            + ": $write(\"1\"); default: $write(\"0\"); endcase")
                             .run(9, 2).logs(fits ? "1" : "0");
-                    of("", "initial " + word + " (2'b" + one + "1) default: $write(\"0\"); 2'b00, 2'b" + other + "1: $write(\"1\"); endcase")
+                    of("", "initial " + word + " (2'b" + one + "1) default: $write(\"0\"); 2'b00, 2'b" + other
+                            + "1: $write(\"1\"); endcase")
                             .run(9, 2).logs(fits ? "1" : "0");
                 }
             }
         }
         // All get the greatest L, those of later choices, too.
-        of("", "initial case (8'd16) 8'd1: ; 8'd2, 4'd15 + 4'd1: $write(\"y\"); default: $write(\"n\"); endcase").run(9, 2).logs("y");
+        of("", "initial case (8'd16) 8'd1: ; 8'd2, 4'd15 + 4'd1: $write(\"y\"); default: $write(\"n\"); endcase").run(9,
+                2).logs("y");
         of("", "initial case (8'd16) 1'b1: ; default: ; 4'd8 << 1: $write(\"y\"); endcase").run(9, 2).logs("y");
         of("", "initial case (4'sb1000) 4'sd1: ; 4'sd2: ; 8'sb11111000: $write(\"y\"); endcase").run(9, 2).logs("y");
         of("", "initial case (4'sb1000) 4'sd1: ; 4'sd2: ; 8'b00001000: $write(\"y\"); 8'sb11111000: ; endcase").run(9, 2).logs("y");
-        of("", "initial case (4'sb1000) 8'sb11111000: $write(\"n\"); 4'sd2: ; 4'sb1000: $write(\"y\"); 2'd1: ; endcase").run(9, 2).logs("y");
+        of("", "initial case (4'sb1000) 8'sb11111000: $write(\"n\"); 4'sd2: ; 4'sb1000: $write(\"y\"); 2'd1: ; endcase").run(9,
+                2).logs("y");
         of("", "initial case (1) 0: $write(\"0\"); endcase").run(9, 2).logs("").count(5, 2);
         of("", "initial case (1) 1: $write(\"1\"); 1: $write(\"2\"); endcase").run(9, 2).logs("1");
         of("", "initial case (1) 0, 1, 2: ; default: $write(\"d\"); endcase").run(9, 2).logs("").count(5, 3);
         of("reg a;", "initial begin a = 1; case (1'b1) a: $write(\"a\"); default: ; endcase end").run(9, 2).logs("a");
         of("", "initial case (64'hffffffffffffffff) 32'shffffffff: $write(\"s\"); 64'hffffffffffffffff: $write(\"u\"); endcase").run(9, 2).logs("u");
         of("", "initial case (64'shffffffffffffffff) 32'shffffffff: $write(\"s\"); 64'hffffffffffffffff: $write(\"u\"); endcase").run(9, 2).logs("u");
-        of("", "initial case (64'shffffffffffffffff) 32'shffffffff: $write(\"s\"); default: $write(\"u\"); endcase").run(9, 2).logs("s");
+        of("", "initial case (64'shffffffffffffffff) 32'shffffffff: $write(\"s\"); default: $write(\"u\"); endcase").run(9,
+                2).logs("s");
     }
 
     /** "repeat: E (without sign; x or z: 0) times", for and while "as long as .. TRUE". */

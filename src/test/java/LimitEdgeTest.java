@@ -36,8 +36,10 @@ public final class LimitEdgeTest {
                 "module t(input a" + many(", output r#", 399) + ", input \u00a7b); endmodule");
         Case.edge("of instances", 5, "module t;" + many("u x#();", 100) + "endmodule module u(input a); reg b, c, d; endmodule",
                 "module t; reg r;" + many("u x#();", 100) + "endmodule module u(input a); reg b, c, \u00a7d; endmodule");
-        Case.edge("ports of instances", 5, "module t;" + many("u x#();", 100) + "endmodule module u(input a, input b); reg c, d; endmodule",
-                "module t; reg q, r, s;" + many("u x#();", 100) + "endmodule module u(input a, input \u00a7b); reg c, d; endmodule");
+        Case.edge("ports of instances", 5, "module t;" + many("u x#();", 100)
+                + "endmodule module u(input a, input b); reg c, d; endmodule",
+                "module t; reg q, r, s;" + many("u x#();", 100)
+                        + "endmodule module u(input a, input \u00a7b); reg c, d; endmodule");
         // Parameters and instances are neither.
         Case c = Case.of("neither", "module t;" + many("localparam p# = 1;", 500) + many("u x#();", 100) + many("reg r#;", 400)
                 + "endmodule module u; endmodule");
@@ -48,7 +50,8 @@ public final class LimitEdgeTest {
 
     /** "words of MEMORIES above 8192 together." */
     private static void words() {
-        Case.edge("in two", 5, "module t; reg m[0:4095], n[4096:1]; endmodule", "module t; reg m[0:4095], n[4096:1], \u00a7k[3:3]; endmodule");
+        Case.edge("in two", 5, "module t; reg m[0:4095], n[4096:1]; endmodule",
+                "module t; reg m[0:4095], n[4096:1], \u00a7k[3:3]; endmodule");
         Case.edge("in many", 5, "module t; reg [63:0] a" + many(", m#[1:1024]", 8) + ", b; endmodule",
                 "module t; reg [63:0] a, c[0:0]" + many(", m#[1:1024]", 7) + ", \u00a7b[1:1024]; endmodule");
         Case.edge("in instances", 5, "module t; u x(); u y(); endmodule module u; reg m[1:4096]; endmodule",
@@ -57,7 +60,8 @@ public final class LimitEdgeTest {
                 "module t; reg m[0:4095], k[\u00a70:4096]; endmodule");
         Case.edge("beside 398 others", 5, "module t; reg m[0:4095]" + many(", r#", 398) + ", n[4096:1]; endmodule",
                 "module t; reg m[0:4095]" + many(", r#", 398) + ", n[4096:1], \u00a7k; endmodule");
-        Case c = Case.of("the last words", "module t; reg [63:0] m[0:4095], n[4096:1]; initial begin n[4096] = 7; m[4095] = 6; end endmodule");
+        Case c = Case.of("the last words",
+                "module t; reg [63:0] m[0:4095], n[4096:1]; initial begin n[4096] = 7; m[4095] = 6; end endmodule");
         c.run(9, 2).due("word", c.theatre.value(1, 4095, 0), 7);
         c.due("word", c.theatre.value(0, 4095, 0), 6);
         c.notThere("one more", () -> c.theatre.value(1, 4096, 0));
@@ -67,13 +71,18 @@ public final class LimitEdgeTest {
     private static void tasks() {
         Case.edge("assigns", 5, "module t; wire w;" + many("assign w = 1;", 400) + "endmodule",
                 "module t; wire w;" + many("assign w = 1;", 400) + "\u00a7assign w = 1; endmodule");
-        Case.edge("initials", 5, "module t;" + many("initial ;", 400) + "endmodule", "module t;" + many("initial ;", 400) + "\u00a7initial ; endmodule");
-        Case.edge("always", 5, "module t;" + many("always ;", 400) + "endmodule", "module t;" + many("always ;", 400) + "\u00a7always ; endmodule");
+        Case.edge("initials", 5, "module t;" + many("initial ;", 400) + "endmodule", "module t;" + many("initial ;", 400)
+                + "\u00a7initial ; endmodule");
+        Case.edge("always", 5, "module t;" + many("always ;", 400) + "endmodule", "module t;" + many("always ;", 400)
+                + "\u00a7always ; endmodule");
         Case.edge("together", 5, "module t; wire w;" + many("initial ; assign w = 1;", 200) + "endmodule",
                 "module t; wire w; initial ;" + many("initial ; assign w = 1;", 199) + "initial ; \u00a7assign w = 1; endmodule");
-        Case.edge("of instances", 5, "module t;" + many("u x#();", 100) + "endmodule module u; wire w; assign w = 1; " + many("initial ;", 3) + "endmodule",
-                "module t; initial ;" + many("u x#();", 100) + "endmodule module u; wire w; assign w = 1; initial ; initial ; \u00a7initial ; endmodule");
-        Case c = Case.of("all are done", "module t; wire w; integer n; initial n = 0;" + many("initial n = n + 1; assign w = 1;", 199)
+        Case.edge("of instances", 5, "module t;" + many("u x#();", 100) + "endmodule module u; wire w; assign w = 1; "
+                + many("initial ;", 3) + "endmodule",
+                "module t; initial ;" + many("u x#();", 100)
+                        + "endmodule module u; wire w; assign w = 1; initial ; initial ; \u00a7initial ; endmodule");
+        Case c = Case.of("all are done", "module t; wire w; integer n; initial n = 0;"
+                + many("initial n = n + 1; assign w = 1;", 199)
                 + "assign w = 0; endmodule");
         c.count(2, 200).count(3, 200).count(6, 400).run(2000, 2).is(0, "x").due("n", c.theatre.value(1, 0, 0), 199);
     }
@@ -84,14 +93,17 @@ public final class LimitEdgeTest {
         String tasks = "module t; wire w, v;" + many("initial ;", 399);
         Case.edge("an input", 5, tasks + "u x(.a(w)); endmodule" + port, tasks + "u x(.a(w), \u00a7.b(w)); endmodule" + port);
         Case.edge("an output", 5, tasks + "u x(.c(w)); endmodule" + port, tasks + "u x(.a(w), \u00a7.c(w)); endmodule" + port);
-        Case.edge("empty ones", 5, tasks + "u x(.a(), .c(w), .b()); endmodule" + port, tasks + "u x(.a(w), .b(), \u00a7.c(w)); endmodule" + port);
+        Case.edge("empty ones", 5, tasks + "u x(.a(), .c(w), .b()); endmodule" + port, tasks
+                + "u x(.a(w), .b(), \u00a7.c(w)); endmodule" + port);
         Case.edge("not known", 5, tasks + "u x(.c(w)); endmodule" + port, tasks + "u x(.c(w), \u00a7.q(w)); endmodule" + port);
-        Case.edge("not known and empty", 2, tasks + "u x(.c(w)); endmodule" + port, tasks + "u x(.c(w), .\u00a7q()); endmodule" + port);
+        Case.edge("not known and empty", 2, tasks + "u x(.c(w)); endmodule" + port, tasks + "u x(.c(w), .\u00a7q()); endmodule"
+                + port);
         Case.edge("linked twice", 5, tasks + "u x(.c(w)); endmodule" + port, tasks + "u x(.c(w), \u00a7.c(w)); endmodule" + port);
         Case.edge("with a fault", 5, tasks + "u x(.c(w)); endmodule" + port, tasks + "u x(.c(w), \u00a7.a(q)); endmodule" + port);
         Case.edge("its ITEMS behind it", 5, tasks + "u x(.a(w)); endmodule module u(input a); endmodule",
                 tasks + "u x(.a(w)); endmodule module u(input a); \u00a7initial ; endmodule");
-        Case.edge("parameters are none", 5, tasks + "u #(.P(1), .Q(2)) x(.a(w)); endmodule module u #(parameter P = 1, parameter Q = 2) (input a); endmodule",
+        Case.edge("parameters are none", 5, tasks
+                + "u #(.P(1), .Q(2)) x(.a(w)); endmodule module u #(parameter P = 1, parameter Q = 2) (input a); endmodule",
                 tasks + "initial ; u #(.P(1), .Q(2)) x(\u00a7.a(w)); endmodule module u #(parameter P = 1, parameter Q = 2) (input a); endmodule");
         Case.of("counted", "module t; wire w, v; u x(.a(w), .b(), .c(v)); u y(); endmodule" + port).count(2, 2).count(1, 8);
     }
@@ -102,7 +114,8 @@ public final class LimitEdgeTest {
                 "module t;" + many("u x#();", 100) + "u \u00a7y(); endmodule module u; endmodule");
         Case.edge("in others", 5, "module t;" + many("u x#();", 50) + "endmodule module u; v y(); endmodule module v; endmodule",
                 "module t; v a();" + many("u x#();", 50) + "endmodule module u; v \u00a7y(); endmodule module v; endmodule");
-        Case.edge("with links before its NAME", 5, "module t;" + many("u x#();", 99) + "u #(.P(1)) y(); endmodule module u #(parameter P = 1); endmodule",
+        Case.edge("with links before its NAME", 5, "module t;" + many("u x#();", 99)
+                + "u #(.P(1)) y(); endmodule module u #(parameter P = 1); endmodule",
                 "module t;" + many("u x#();", 100) + "u #(.Q(q)) \u00a7y(); endmodule module u #(parameter P = 1); endmodule");
         Case c = Case.of("the last", "module t;" + many("u x#();", 100) + "endmodule module u; reg a; endmodule");
         c.dueText("name", c.name(99), "x99.a");
@@ -119,7 +132,8 @@ public final class LimitEdgeTest {
     /** "or above 20 deep in one another." */
     private static void deep() {
         Case.edge("20", 5, chain(20, "reg a;"), chain(20, "v \u00a7y(); endmodule module v;"));
-        Case.edge("itself", 5, "module t; u x(); endmodule module u; endmodule", "module t; u x(); endmodule module u; u \u00a7x(); endmodule");
+        Case.edge("itself", 5, "module t; u x(); endmodule module u; endmodule",
+                "module t; u x(); endmodule module u; u \u00a7x(); endmodule");
         Case c = Case.of("20", chain(20, "reg a;"));
         c.dueText("name", c.name(0), "x.".repeat(20) + "a");
         // Those that are over do not count.
@@ -163,7 +177,8 @@ public final class LimitEdgeTest {
     /** "2 a NAME not known or known and not to be (modules, parameters, ports, NAMES in a MODULE; ..)." */
     private static void twice() {
         String[] firsts = {"reg a;", "wire a;", "wand [1:0] a;", "integer a;", "localparam a = 1;", "reg a[1:0];", "u a();"};
-        String[] seconds = {"reg \u00a7a;", "wor \u00a7a;", "integer \u00a7a;", "localparam \u00a7a = 1;", "reg \u00a7a[1:0];", "u \u00a7a();"};
+        String[] seconds = {"reg \u00a7a;", "wor \u00a7a;", "integer \u00a7a;", "localparam \u00a7a = 1;", "reg \u00a7a[1:0];",
+                "u \u00a7a();"};
         String rest = " u z(); endmodule module u; reg a; endmodule";
         for (String first : firsts) {
             for (String second : seconds) {
@@ -175,29 +190,42 @@ public final class LimitEdgeTest {
         }
         Case.of("in other MODULES", "module a #(parameter b = 1) (input c); u u(); v v(); endmodule module u; reg a, b, c, v; "
                 + "endmodule module v; reg a, b, c, u; endmodule").count(1, 9);
-        String[] places = {"a = \u00a7q;", "a = 1 + \u00a7q[0];", "a = 1 + \u00a7q[1:0];", "\u00a7q = 1;", "\u00a7q[0] = 1;", "\u00a7q[1:0] <= 1;", "{a, \u00a7q} = 1;",
-            "#\u00a7q ;", "@(\u00a7q) ;", "@(a or negedge \u00a7q[0]) ;", "wait (\u00a7q) ;", "if (\u00a7q) ;", "case (\u00a7q) 1: ; endcase", "case (1) \u00a7q: ; endcase",
-            "for (\u00a7q = 0; 0; a = 1) ;", "for (a = 0; \u00a7q; a = 1) ;", "for (a = 0; 0; \u00a7q = 1) ;", "for (a = 0; 0; a = \u00a7q) ;", "while (\u00a7q) ;",
-            "repeat (\u00a7q) ;", "$write(\u00a7q);", "a = #\u00a7q 1;", "a = @(\u00a7q) 1;", "a <= #\u00a7q 1;", "a = {\u00a7q{1'b1}};", "a = {1'b1, \u00a7q};",
-            "a = 1 ? \u00a7q : 1;", "a = $signed(\u00a7q);", "a = !\u00a7q;", "a = a[\u00a7q];", "a[\u00a7q] = 1;", "a = a[\u00a7q:0];", "a[0:\u00a7q] = 1;"};
+        String[] places = {"a = \u00a7q;", "a = 1 + \u00a7q[0];", "a = 1 + \u00a7q[1:0];", "\u00a7q = 1;", "\u00a7q[0] = 1;",
+                "\u00a7q[1:0] <= 1;", "{a, \u00a7q} = 1;",
+            "#\u00a7q ;", "@(\u00a7q) ;", "@(a or negedge \u00a7q[0]) ;", "wait (\u00a7q) ;", "if (\u00a7q) ;",
+                    "case (\u00a7q) 1: ; endcase", "case (1) \u00a7q: ; endcase",
+            "for (\u00a7q = 0; 0; a = 1) ;", "for (a = 0; \u00a7q; a = 1) ;", "for (a = 0; 0; \u00a7q = 1) ;",
+                    "for (a = 0; 0; a = \u00a7q) ;", "while (\u00a7q) ;",
+            "repeat (\u00a7q) ;", "$write(\u00a7q);", "a = #\u00a7q 1;", "a = @(\u00a7q) 1;", "a <= #\u00a7q 1;",
+                    "a = {\u00a7q{1'b1}};", "a = {1'b1, \u00a7q};",
+            "a = 1 ? \u00a7q : 1;", "a = $signed(\u00a7q);", "a = !\u00a7q;", "a = a[\u00a7q];", "a[\u00a7q] = 1;",
+                    "a = a[\u00a7q:0];", "a[0:\u00a7q] = 1;"};
         for (String place : places) {
             String right = place.replace("\u00a7q", "b");
-            Case.edge("not known in " + place, 2, "module t; reg [1:0] a; reg [1:0] b; " + (isConstant(place) ? "" : "initial " + right) + " endmodule",
+            Case.edge("not known in " + place, 2, "module t; reg [1:0] a; reg [1:0] b; " + (isConstant(place) ? "" : "initial "
+                    + right) + " endmodule",
                     "module t; reg [1:0] a; reg [1:0] b; initial " + place + " endmodule");
         }
         Case.edge("a MODULE's NAME is none in it", 2, "module t; reg t; endmodule", "module t; initial \u00a7t = 1; endmodule");
-        Case.edge("not before it is declared", 2, "module t; reg a; initial a = 1; endmodule", "module t; initial \u00a7a = 1; reg a; endmodule");
+        Case.edge("not before it is declared", 2, "module t; reg a; initial a = 1; endmodule",
+                "module t; initial \u00a7a = 1; reg a; endmodule");
         Case.edge("not behind its instance", 2, "module t; u x(); reg b; endmodule module u; reg b; initial b = 1; endmodule",
                 "module t; reg b; u x(); endmodule module u; initial \u00a7b = 1; endmodule");
         Case.edge("not an instance's", 2, "module t; u x(); reg b; endmodule module u; reg a; endmodule",
                 "module t; u x(); reg b; initial b = \u00a7a; endmodule module u; reg a; endmodule");
         String inner = " module u #(parameter P = 1) (input a, output b); localparam L = 1; wire c; endmodule";
-        Case.edge("a port", 2, "module t; wire w; u x(.a(w), .b(w)); endmodule" + inner, "module t; wire w; u x(.\u00a7c(w)); endmodule" + inner);
-        Case.edge("a port linked twice", 2, "module t; wire w; u x(.a(w)); endmodule" + inner, "module t; wire w; u x(.a(w), .b(), .\u00a7a(w)); endmodule" + inner);
-        Case.edge("a parameter", 2, "module t; u #(.P(1)) x(); endmodule" + inner, "module t; u #(.\u00a7L(1)) x(); endmodule" + inner);
-        Case.edge("a parameter linked twice", 2, "module t; u #(.P(1)) x(); endmodule" + inner, "module t; u #(.P(1), .\u00a7P(1)) x(); endmodule" + inner);
-        Case.edge("a port as a parameter", 2, "module t; u #(.P(1)) x(); endmodule" + inner, "module t; u #(.\u00a7a(1)) x(); endmodule" + inner);
-        Case.edge("a parameter as a port", 2, "module t; u x(.a(1)); endmodule" + inner, "module t; u x(.\u00a7P(1)); endmodule" + inner);
+        Case.edge("a port", 2, "module t; wire w; u x(.a(w), .b(w)); endmodule" + inner,
+                "module t; wire w; u x(.\u00a7c(w)); endmodule" + inner);
+        Case.edge("a port linked twice", 2, "module t; wire w; u x(.a(w)); endmodule" + inner,
+                "module t; wire w; u x(.a(w), .b(), .\u00a7a(w)); endmodule" + inner);
+        Case.edge("a parameter", 2, "module t; u #(.P(1)) x(); endmodule" + inner, "module t; u #(.\u00a7L(1)) x(); endmodule"
+                + inner);
+        Case.edge("a parameter linked twice", 2, "module t; u #(.P(1)) x(); endmodule" + inner,
+                "module t; u #(.P(1), .\u00a7P(1)) x(); endmodule" + inner);
+        Case.edge("a port as a parameter", 2, "module t; u #(.P(1)) x(); endmodule" + inner,
+                "module t; u #(.\u00a7a(1)) x(); endmodule" + inner);
+        Case.edge("a parameter as a port", 2, "module t; u x(.a(1)); endmodule" + inner, "module t; u x(.\u00a7P(1)); endmodule"
+                + inner);
     }
 
     private static boolean isConstant(String place) {
@@ -254,7 +282,8 @@ public final class LimitEdgeTest {
         Case.edge("an output", 3, "module t; u x(.a(1)); endmodule module u(input a); endmodule",
                 "module t; u x(.a(\u00a71)); endmodule module u(output a); endmodule");
         Case.edge("an input that's a reg", 3, "module t(output reg a); endmodule", "module t(input reg \u00a7a); endmodule");
-        Case.edge("an input that's a reg", 3, "module t(input wire a); endmodule", "module t(input reg signed [1:0] \u00a7a); endmodule");
+        Case.edge("an input that's a reg", 3, "module t(input wire a); endmodule",
+                "module t(input reg signed [1:0] \u00a7a); endmodule");
     }
 
     /** "the first found of these (of the first MODULE, ITEM, link or declared NAME that has one ..)." */
@@ -278,8 +307,10 @@ public final class LimitEdgeTest {
         // The same with the MODULE before the TOP: the first found has a greater PLACE than the others.
         String inner = "module u #(parameter P = 1, parameter R = %) (input [%:0] a, input b); initial % = 1; endmodule module t; reg y; ";
         String[][] firsts = {{"q 64 q", "u #(.P(q)) \u00a7y(.a(q)); endmodule"}, {"q 64 q", "u #(.P(\u00a7q)) x(.a(q)); endmodule"},
-            {"q 64 q", "u #(.P(1), .\u00a7S(1)) x(.a(q)); endmodule"}, {"\u00a7q 64 q", "u x(.a(q)); endmodule"}, {"1 \u00a764 q", "u x(.a(q)); endmodule"},
-            {"1 63 q", "u x(.a(\u00a7q)); endmodule"}, {"1 63 q", "u x(.a(1), .b(\u00a7q)); endmodule"}, {"1 63 q", "u x(.a(1), .\u00a7a(1)); endmodule"},
+            {"q 64 q", "u #(.P(1), .\u00a7S(1)) x(.a(q)); endmodule"}, {"\u00a7q 64 q", "u x(.a(q)); endmodule"},
+                    {"1 \u00a764 q", "u x(.a(q)); endmodule"},
+            {"1 63 q", "u x(.a(\u00a7q)); endmodule"}, {"1 63 q", "u x(.a(1), .b(\u00a7q)); endmodule"}, {"1 63 q",
+                    "u x(.a(1), .\u00a7a(1)); endmodule"},
             {"1 63 \u00a7q", "u x(.a(1)); assign q = 1; endmodule"}, {"1 63 q", "assign \u00a7q = 1; u x(.a(1)); endmodule"},
             {"1 63 q", "initial \u00a7q = 1; u x(.a(1)); endmodule"}, {"1 63 q", "wire [\u00a764:0] w; u x(.a(1)); endmodule"},
             {"1 63 q", "localparam L = \u00a7q; u x(.a(1)); endmodule"}, {"1 63 q", "reg z, \u00a7z; u x(.a(1)); endmodule"},

@@ -75,9 +75,11 @@ public final class RunEdgeTest {
 
     /** "2 if nothing is left to be done (also if all of n was paid ..)." */
     private static void nothingLeft() {
-        String[] texts = {"initial ;", "initial begin a = 1; end", "initial #1 ;", "initial a <= 1;", "initial @(a) ;", "initial wait (0) ;",
+        String[] texts = {"initial ;", "initial begin a = 1; end", "initial #1 ;", "initial a <= 1;", "initial @(a) ;",
+                "initial wait (0) ;",
             "initial @* a = b;", "assign w = a;", "initial if (0) ; else ;", "initial if (0) ;", "initial case (0) 1: ; endcase",
-            "initial repeat (0) ;", "initial repeat (2) ;", "initial while (0) ;", "initial for (a = 0; a == 0; a = 1) ;", "initial $write(\"a\");",
+            "initial repeat (0) ;", "initial repeat (2) ;", "initial while (0) ;", "initial for (a = 0; a == 0; a = 1) ;",
+                    "initial $write(\"a\");",
             "initial a = #1 1;", "initial a = @(b) 1;", "always @(a) ;", "always wait (0) ;", "initial a <= #3 0;"};
         int[] costs = {2, 3, 4, 3, 2, 2, 2, 1, 3, 2, 2, 2, 6, 2, 4, 2, 3, 2, 2, 2, 3};
         for (int k = 0; k < texts.length; k++) {
@@ -109,7 +111,8 @@ public final class RunEdgeTest {
         c = Case.of("LATER", "module t; reg a, b; initial begin a <= 1; b <= 1; end endmodule").run(4, 0);
         c.count(6, 0).count(8, 2).run(1, 0).count(8, 0).count(6, 1).is(0, "1").is(1, "x").run(1, 2);
         c = Case.of("FUTURE", "module t; reg a, b; initial #3 a = 1; initial b <= #3 1; endmodule").run(4, 0);
-        c.count(9, 2).time(0).run(1, 0).count(9, 0).time(3).count(6, 0).count(8, 1).run(1, 0).is(0, "1").count(8, 1).run(1, 2).is(1, "1");
+        c.count(9, 2).time(0).run(1, 0).count(9, 0).time(3).count(6, 0).count(8, 1).run(1, 0).is(0, "1").count(8, 1).run(1,
+                2).is(1, "1");
         c = Case.of("at the end", "module t; initial #3 ; endmodule").run(2, 0).time(0).run(2, 2).time(3);
     }
 

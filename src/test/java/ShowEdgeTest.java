@@ -36,7 +36,8 @@ public final class ShowEdgeTest {
             String greatest = width + "'sh" + half.subtract(BigInteger.ONE).toString(16);
             shows("$write(\"%d|%0d|%d|%0d\", " + plain + ", " + plain + ", " + width + "'d0, " + width + "'d0);",
                     most + "|" + most + "|" + padded("0", places) + "|0");
-            shows("$write(\"%d|%0d|%d|%0d|%d\", " + least + ", " + least + ", " + greatest + ", " + greatest + ", " + width + "'sd0);",
+            shows("$write(\"%d|%0d|%d|%0d|%d\", " + least + ", " + least + ", " + greatest + ", " + greatest + ", " + width
+                    + "'sd0);",
                     padded("-" + half, signedPlaces) + "|-" + half + "|" + padded("" + half.subtract(BigInteger.ONE), signedPlaces)
                             + "|" + half.subtract(BigInteger.ONE) + "|" + padded("0", signedPlaces));
             shows("$write(" + plain + ", " + width + "'bx, " + width + "'sbz);",
@@ -46,9 +47,11 @@ public final class ShowEdgeTest {
 
     /** "%b all bits, x and z", "%0b ..: zeros at the beginning left out but for the last place." */
     private static void bits() {
-        String[][] pairs = {{"1'b0", "0", "0"}, {"1'b1", "1", "1"}, {"4'b0000", "0000", "0"}, {"4'b0001", "0001", "1"}, {"4'b0x01", "0x01", "x01"},
+        String[][] pairs = {{"1'b0", "0", "0"}, {"1'b1", "1", "1"}, {"4'b0000", "0000", "0"}, {"4'b0001", "0001", "1"},
+                {"4'b0x01", "0x01", "x01"},
             {"4'b00z0", "00z0", "z0"}, {"4'bx000", "x000", "x000"}, {"64'b0", "0".repeat(64), "0"},
-            {"64'h8000000000000000", "1" + "0".repeat(63), "1" + "0".repeat(63)}, {"64'bz", "z".repeat(64), "z".repeat(64)}, {"4'sb1000", "1000", "1000"}};
+            {"64'h8000000000000000", "1" + "0".repeat(63), "1" + "0".repeat(63)}, {"64'bz", "z".repeat(64), "z".repeat(64)},
+                    {"4'sb1000", "1000", "1000"}};
         for (String[] pair : pairs) {
             shows("$write(\"%b|%0b\", " + pair[0] + ", " + pair[0] + ");", pair[1] + "|" + pair[2]);
         }
@@ -56,11 +59,16 @@ public final class ShowEdgeTest {
 
     /** "%h by fours (all x: x, all z: z, else with an x: X, with a z: Z)." */
     private static void fours() {
-        String[][] pairs = {{"4'hf", "f", "f"}, {"4'ha", "a", "a"}, {"4'h9", "9", "9"}, {"4'h0", "0", "0"}, {"8'h0f", "0f", "f"}, {"8'h00", "00", "0"},
-            {"4'bxxxx", "x", "x"}, {"4'bzzzz", "z", "z"}, {"4'bxxxz", "X", "X"}, {"4'bzzz0", "Z", "Z"}, {"4'bzx01", "X", "X"}, {"4'b1z11", "Z", "Z"},
-            {"4'b000x", "X", "X"}, {"8'b0000000x", "0X", "X"}, {"8'b0000zzzz", "0z", "z"}, {"12'b0000_zzzz_0000", "0z0", "z0"}, {"5'b11111", "1f", "1f"},
-            {"5'b00000", "00", "0"}, {"5'b01111", "0f", "f"}, {"1'b1", "1", "1"}, {"1'bx", "x", "x"}, {"2'bz0", "Z", "Z"}, {"3'b111", "7", "7"},
-            {"64'hfedcba9876543210", "fedcba9876543210", "fedcba9876543210"}, {"61'h1000000000000001", "1000000000000001", "1000000000000001"}};
+        String[][] pairs = {{"4'hf", "f", "f"}, {"4'ha", "a", "a"}, {"4'h9", "9", "9"}, {"4'h0", "0", "0"}, {"8'h0f", "0f",
+                "f"}, {"8'h00", "00", "0"},
+            {"4'bxxxx", "x", "x"}, {"4'bzzzz", "z", "z"}, {"4'bxxxz", "X", "X"}, {"4'bzzz0", "Z", "Z"}, {"4'bzx01", "X", "X"},
+                    {"4'b1z11", "Z", "Z"},
+            {"4'b000x", "X", "X"}, {"8'b0000000x", "0X", "X"}, {"8'b0000zzzz", "0z", "z"}, {"12'b0000_zzzz_0000", "0z0", "z0"},
+                    {"5'b11111", "1f", "1f"},
+            {"5'b00000", "00", "0"}, {"5'b01111", "0f", "f"}, {"1'b1", "1", "1"}, {"1'bx", "x", "x"}, {"2'bz0", "Z", "Z"},
+                    {"3'b111", "7", "7"},
+            {"64'hfedcba9876543210", "fedcba9876543210", "fedcba9876543210"}, {"61'h1000000000000001", "1000000000000001",
+                    "1000000000000001"}};
         for (String[] pair : pairs) {
             shows("$write(\"%h|%0h\", " + pair[0] + ", " + pair[0] + ");", pair[1] + "|" + pair[2]);
         }
@@ -68,7 +76,8 @@ public final class ShowEdgeTest {
 
     /** "with all x: x, all z: z, some x: X, else Z, likewise." */
     private static void unclearDecimals() {
-        String[][] pairs = {{"8'bx", "  x", "x"}, {"8'bz", "  z", "z"}, {"8'bxxxxxxx0", "  X", "X"}, {"8'bzzzzzzz1", "  Z", "Z"}, {"8'bxzzzzzzz", "  X", "X"},
+        String[][] pairs = {{"8'bx", "  x", "x"}, {"8'bz", "  z", "z"}, {"8'bxxxxxxx0", "  X", "X"}, {"8'bzzzzzzz1", "  Z",
+                "Z"}, {"8'bxzzzzzzz", "  X", "X"},
             {"8'b0000000z", "  Z", "Z"}, {"1'bx", "x", "x"}, {"1'sbz", " z", "z"}, {"64'bx1", " ".repeat(19) + "X", "X"}};
         for (String[] pair : pairs) {
             shows("$write(\"%d|%0d\", " + pair[0] + ", " + pair[0] + ");", pair[1] + "|" + pair[2]);
@@ -85,7 +94,8 @@ public final class ShowEdgeTest {
     /** "%t as %d, 20 places." */
     private static void times() {
         shows("$write(\"%t|%0t\", $time, $time);", " ".repeat(19) + "0|0");
-        shows("#1000000000 $write(\"%t|%0t|%d\", $time, $time, $time);", padded("1000000000", 20) + "|1000000000|" + padded("1000000000", 20));
+        shows("#1000000000 $write(\"%t|%0t|%d\", $time, $time, $time);", padded("1000000000", 20) + "|1000000000|"
+                + padded("1000000000", 20));
         shows("$write(\"%t\", 64'd18446744073709551615);", "18446744073709551615");
         shows("$write(\"%t|%0t\", 64'sh8000000000000000, -5);", "-9223372036854775808|-5");
         shows("$write(\"%t%t%t\", 1'b1, 4'bx, 4'bz1);", padded("1", 20) + padded("x", 20) + padded("Z", 20));
@@ -129,7 +139,8 @@ public final class ShowEdgeTest {
             String shown = c == 't' ? " ".repeat(19) + "1" : c == 'c' ? "\u0001" : "1";
             shows("$write(\"[%" + c + "]\", 1'b1);", known ? "[" + shown + "]" : "[%" + c + "]1");
             if (c != '0') {
-                shows("$write(\"[%0" + c + "]\", 1'b1);", known ? "[" + shown.trim().replaceAll("^$", "\u0001") + "]" : "[%0" + c + "]1");
+                shows("$write(\"[%0" + c + "]\", 1'b1);", known ? "[" + shown.trim().replaceAll("^$", "\u0001") + "]" : "[%0"
+                        + c + "]1");
             }
         }
     }
@@ -138,12 +149,15 @@ public final class ShowEdgeTest {
     private static void fullLog() {
         String hundred = "0123456789".repeat(10);
         String start = "module t; initial begin repeat (327) $write(\"" + hundred + "\"); ";
-        Case exact = Case.of("32768", start + "$write(\"" + hundred.substring(0, 68) + "\"); end endmodule").run(20000, 2).count(4, 32768);
+        Case exact = Case.of("32768", start + "$write(\"" + hundred.substring(0, 68) + "\"); end endmodule").run(20000,
+                2).count(4, 32768);
         exact.due("the last byte", exact.theatre.log(32767), '7');
-        Case one = Case.of("32769", start + "$write(\"" + hundred.substring(0, 67) + "\"); $display(\"ab\"); $write(\"c\"); end endmodule");
+        Case one = Case.of("32769", start + "$write(\"" + hundred.substring(0, 67)
+                + "\"); $display(\"ab\"); $write(\"c\"); end endmodule");
         one.run(20000, 2).count(4, 32768).due("the last byte", one.theatre.log(32767), 'a');
         one.refusedUnchanged("log(32768)", IndexOutOfBoundsException.class, () -> one.theatre.log(32768));
-        Case number = Case.of("in the midst", start + "$write(\"" + hundred.substring(0, 60) + "\"); $write(\"%b\", 64'bx); end endmodule");
+        Case number = Case.of("in the midst", start + "$write(\"" + hundred.substring(0, 60)
+                + "\"); $write(\"%b\", 64'bx); end endmodule");
         number.run(20000, 2).count(4, 32768).due("the last byte", number.theatre.log(32767), 'x');
         number.due("before it", number.theatre.log(32759), '9');
         // It goes on without it.

@@ -26,7 +26,8 @@ public final class SizeEdgeTest {
         c.run(9, 2).is(1, "1").count(5, 1);
         c = Case.of("a long CONSTANT", "module t; localparam P = " + "1-".repeat(8000) + "1; reg [P + 8060:0] a; endmodule");
         c.due("WIDTH", c.theatre.told(0, 0), 62);
-        c = Case.of("many numbers", "module t; reg [7:0] a; localparam P = 5; initial begin " + "a=P[2]+P[1];".repeat(2000) + " end endmodule");
+        c = Case.of("many numbers", "module t; reg [7:0] a; localparam P = 5; initial begin " + "a=P[2]+P[1];".repeat(2000)
+                + " end endmodule");
         c.run(20000, 2).due("a", c.theatre.value(0, 0, 0), 1);
         c = Case.of("many conditions", "module t; reg [7:0] a; initial a = " + "(0?1:2)+".repeat(3000) + "0; endmodule");
         c.run(9, 2).due("a", c.theatre.value(0, 0, 0), 6000 & 255);
@@ -49,18 +50,24 @@ public final class SizeEdgeTest {
     }
 
     private static void longLists() {
-        Case.of("many labels", "module t; initial case (5) " + "1,".repeat(8000) + "5: $write(\"y\"); endcase endmodule").run(9, 2).logs("y");
-        Case.of("many choices", "module t; initial case (5) " + "1:;".repeat(8000) + "5: $write(\"y\"); default: ; endcase endmodule")
+        Case.of("many labels", "module t; initial case (5) " + "1,".repeat(8000) + "5: $write(\"y\"); endcase endmodule").run(9,
+                2).logs("y");
+        Case.of("many choices", "module t; initial case (5) " + "1:;".repeat(8000)
+                + "5: $write(\"y\"); default: ; endcase endmodule")
                 .run(9, 2).logs("y");
         Case.of("many ARGS", "module t; initial $write(" + "1'b1,".repeat(6000) + "\"e\"); endmodule").run(9, 2).count(4, 6001);
-        Case c = Case.of("many EVENTS", "module t; reg a, b; initial begin @(" + "a or ".repeat(5000) + "negedge b) $write(\"e\"); end endmodule");
+        Case c = Case.of("many EVENTS", "module t; reg a, b; initial begin @(" + "a or ".repeat(5000)
+                + "negedge b) $write(\"e\"); end endmodule");
         c.run(9, 2);
         c.theatre.set(1, 0, 0, 0);
         c.run(9, 2).logs("e");
         Case.of("a long STRING", "module t; initial $write(\"" + "a\\n".repeat(10000) + "\"); endmodule").run(9, 2).count(4, 20000);
-        Case.of("many LEFTS", "module t; reg a; initial begin " + ("{" + "a,".repeat(63) + "a} = 5;").repeat(200) + " end endmodule").run(999, 2).is(0, "1");
-        Case.of("many STATEMENTS", "module t; initial begin " + ";".repeat(32700) + " end endmodule").run(20000, 0).run(20000, 2).count(5, 32702);
-        Case.of("many elses", "module t; reg a; initial begin " + "if(0);else;".repeat(2900) + " a = 1; end endmodule").run(20000, 2).is(0, "1");
+        Case.of("many LEFTS", "module t; reg a; initial begin " + ("{" + "a,".repeat(63) + "a} = 5;").repeat(200)
+                + " end endmodule").run(999, 2).is(0, "1");
+        Case.of("many STATEMENTS", "module t; initial begin " + ";".repeat(32700) + " end endmodule").run(20000, 0).run(20000,
+                2).count(5, 32702);
+        Case.of("many elses", "module t; reg a; initial begin " + "if(0);else;".repeat(2900)
+                + " a = 1; end endmodule").run(20000, 2).is(0, "1");
         Case.of("full of SPACES", "module t;" + " \t\r\n".repeat(8180) + "endmodule").run(1, 2);
     }
 
@@ -76,15 +83,19 @@ public final class SizeEdgeTest {
     }
 
     private static void manyParameters() {
-        Case.of("localparams", "module t; localparam p = 0;" + many("localparam q#=#;", 1500) + " initial $write(\"%0d\", q1499); endmodule")
+        Case.of("localparams", "module t; localparam p = 0;" + many("localparam q#=#;", 1500)
+                + " initial $write(\"%0d\", q1499); endmodule")
                 .run(9, 2).logs("1499");
         String list = many(",parameter q#=p", 1200);
-        Case.of("parameters", "module t; u #(.p(7)) x(); endmodule module u #(parameter p = 0" + list + "); initial $write(\"%0d\", q1199); endmodule")
+        Case.of("parameters", "module t; u #(.p(7)) x(); endmodule module u #(parameter p = 0" + list
+                + "); initial $write(\"%0d\", q1199); endmodule")
                 .run(9, 2).logs("7");
         String links = many(",.q#(#)", 800);
-        Case.of("links", "module t; u #(.p(7)" + links + ") x(); endmodule module u #(parameter p = 0" + many(",parameter q#=p", 800)
+        Case.of("links", "module t; u #(.p(7)" + links + ") x(); endmodule module u #(parameter p = 0" + many(",parameter q#=p",
+                800)
                 + "); initial $write(\"%0d\", q799 + p); endmodule").run(9, 2).logs("806");
-        Case.of("of many instances", "module t;" + many("u ##(.p(#)) x#(.a());", 100) + "endmodule module u #(parameter p = 0) (input a); "
+        Case.of("of many instances", "module t;" + many("u ##(.p(#)) x#(.a());", 100)
+                + "endmodule module u #(parameter p = 0) (input a); "
                 + "initial if (p == 99) $write(\"%0d\", p); endmodule").run(999, 2).logs("99");
         // In one another, and forgotten behind each.
         StringBuilder chain = new StringBuilder("module t; u0 x(); endmodule ");
@@ -96,10 +107,13 @@ public final class SizeEdgeTest {
     }
 
     private static void manyLoops() {
-        Case.of("repeats", "module t; integer n; initial begin n = 0; " + "repeat(2)n=n+1;".repeat(2000) + " end endmodule").run(20000, 2)
+        Case.of("repeats", "module t; integer n; initial begin n = 0; " + "repeat(2)n=n+1;".repeat(2000)
+                + " end endmodule").run(20000, 2)
                 .is(0, "0".repeat(20) + "111110100000");
-        Case.of("waits", "module t; reg a; initial begin a = 1; " + "wait(a);".repeat(3000) + "#1 a = 0; end endmodule").run(20000, 2).is(0, "0");
-        Case.of("in one another", "module t; integer n; initial begin n = 0; " + "repeat(1)".repeat(38) + "n = 1; end endmodule").run(200, 2)
+        Case.of("waits", "module t; reg a; initial begin a = 1; " + "wait(a);".repeat(3000)
+                + "#1 a = 0; end endmodule").run(20000, 2).is(0, "0");
+        Case.of("in one another", "module t; integer n; initial begin n = 0; " + "repeat(1)".repeat(38)
+                + "n = 1; end endmodule").run(200, 2)
                 .is(0, "0".repeat(31) + "1");
     }
 
@@ -118,18 +132,24 @@ public final class SizeEdgeTest {
     /** As many operands and operators waiting as DEPTH lets there be. */
     private static void openOperands() {
         String one = "0||1&&0|0^0&1==0<0<<1+1*";
-        Case.of("brackets", "module t; reg [31:0] a; initial a = " + (one + "(").repeat(40) + "1" + ")".repeat(40) + "; endmodule").run(9, 2);
-        Case.of("braces", "module t; reg [31:0] a; initial a = " + ("{1'b1," + one.replace("0", "1'b0").replace("1&", "1'b1&")).repeat(30) + "1"
+        Case.of("brackets", "module t; reg [31:0] a; initial a = " + (one + "(").repeat(40) + "1" + ")".repeat(40)
+                + "; endmodule").run(9, 2);
+        Case.of("braces", "module t; reg [31:0] a; initial a = " + ("{1'b1," + one.replace("0", "1'b0").replace("1&",
+                "1'b1&")).repeat(30) + "1"
                 + "}".repeat(30) + "; endmodule").run(9, 2);
-        Case.of("signs", "module t; reg [31:0] a; initial a = " + (one + "-(").repeat(20) + "1" + ")".repeat(20) + "; endmodule").run(9, 2);
-        Case.of("choices", "module t; reg [31:0] a; initial a = " + (one + "1?").repeat(40) + "7" + (":" + one + "2").repeat(40) + "; endmodule")
+        Case.of("signs", "module t; reg [31:0] a; initial a = " + (one + "-(").repeat(20) + "1" + ")".repeat(20)
+                + "; endmodule").run(9, 2);
+        Case.of("choices", "module t; reg [31:0] a; initial a = " + (one + "1?").repeat(40) + "7" + (":" + one + "2").repeat(40)
+                + "; endmodule")
                 .run(9, 2);
-        Case.of("indices", "module t; reg [31:0] a, b; initial a = " + (one + "b[").repeat(40) + "1" + "]".repeat(40) + "; endmodule").run(9, 2);
+        Case.of("indices", "module t; reg [31:0] a, b; initial a = " + (one + "b[").repeat(40) + "1" + "]".repeat(40)
+                + "; endmodule").run(9, 2);
     }
 
     /** The last VARIABLES and NETS are read, waited for and driven as the first ones are. */
     private static void farSignals() {
-        Case c = Case.of("far", "module t;" + many("reg [63:0] r#;", 390) + "reg [63:0] a; wire [63:0] b, d; integer n; reg [3:0] m[0:1]; "
+        Case c = Case.of("far", "module t;" + many("reg [63:0] r#;", 390)
+                + "reg [63:0] a; wire [63:0] b, d; integer n; reg [3:0] m[0:1]; "
                 + "assign b[63:62] = a[1:0]; assign b[61:0] = {a[63:60], a[3:2], 56'd0}; assign d = m[1] + r389[63:60]; "
                 + "initial begin n = 0; wait (a[63:60] == 9) n = 1; @(posedge a[0]) n = 2; @(b[58]) n = 3; end endmodule");
         c.run(999, 2);
@@ -165,7 +185,8 @@ public final class SizeEdgeTest {
     /** One TEXT after the other on one object: what an earlier one has used is free again. */
     private static void again() {
         Case c = new Case("again");
-        String sum = "module t; reg [31:0] a; initial begin a = " + "1+".repeat(7000) + "1; " + "a[0]=1;".repeat(1000) + "repeat(2)a=a+1;".repeat(500)
+        String sum = "module t; reg [31:0] a; initial begin a = " + "1+".repeat(7000) + "1; " + "a[0]=1;".repeat(1000)
+                + "repeat(2)a=a+1;".repeat(500)
                 + " end endmodule";
         for (int k = 0; k < 8; k++) {
             c.build(sum);
@@ -192,12 +213,14 @@ public final class SizeEdgeTest {
         }
         Case g = new Case("loops again");
         for (int k = 0; k < 14; k++) {
-            g.build("module t; integer n; initial begin " + "repeat(1);".repeat(3000) + " n = 1; repeat (2) repeat (3) n = n + 1; end endmodule");
+            g.build("module t; integer n; initial begin " + "repeat(1);".repeat(3000)
+                    + " n = 1; repeat (2) repeat (3) n = n + 1; end endmodule");
             g.run(20000, 2).is(0, "0".repeat(29) + "111");
         }
         Case h = new Case("LEFTS again");
         for (int k = 0; k < 8; k++) {
-            h.build("module t; reg a, b; initial begin " + ("{" + "a,".repeat(63) + "a} = 5;").repeat(150) + " {a, b} = 1; end endmodule");
+            h.build("module t; reg a, b; initial begin " + ("{" + "a,".repeat(63) + "a} = 5;").repeat(150)
+                    + " {a, b} = 1; end endmodule");
             h.run(999, 2).is(0, "0").is(1, "1");
         }
         Case i = new Case("drivers again");

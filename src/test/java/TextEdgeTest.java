@@ -90,14 +90,18 @@ public final class TextEdgeTest {
         Case.edge("signed before", 1, "module t; reg signed [1:0] a; endmodule", "module t; reg [1:0] \u00a7signed a; endmodule");
         Case.edge("integer", 1, "module t; integer a, b; endmodule", "module t; integer \u00a7signed a; endmodule");
         Case.edge("no MEMORY of integers", 1, "module t; integer a; endmodule", "module t; integer a\u00a7[1:0]; endmodule");
-        Case.edge("one localparam", 1, "module t; localparam P = 1; endmodule", "module t; localparam P = 1\u00a7, Q = 2; endmodule");
-        Case.edge("one assign", 1, "module t; wire a; assign a = 1; endmodule", "module t; wire a; assign a = 1\u00a7, a = 2; endmodule");
+        Case.edge("one localparam", 1, "module t; localparam P = 1; endmodule",
+                "module t; localparam P = 1\u00a7, Q = 2; endmodule");
+        Case.edge("one assign", 1, "module t; wire a; assign a = 1; endmodule",
+                "module t; wire a; assign a = 1\u00a7, a = 2; endmodule");
         Case.edge("no value there", 1, "module t; wire a; endmodule", "module t; wire a \u00a7= 1; endmodule");
         String inner = " module u #(parameter P = 1) (input a); endmodule";
         Case.edge("no links", 1, "module t; u x(); endmodule" + inner, "module t; u x\u00a7; endmodule" + inner);
         Case.edge("empty links", 1, "module t; u #(.P()) x(.a()); endmodule" + inner, "module t; u x(.a\u00a7); endmodule" + inner);
-        Case.edge("parameter links", 1, "module t; u #(.P(1)) x(); endmodule" + inner, "module t; u #(\u00a7) x(); endmodule" + inner);
-        Case.edge("links have NAMES", 1, "module t; u #(.P(1)) x(); endmodule" + inner, "module t; u #(\u00a71) x(); endmodule" + inner);
+        Case.edge("parameter links", 1, "module t; u #(.P(1)) x(); endmodule" + inner, "module t; u #(\u00a7) x(); endmodule"
+                + inner);
+        Case.edge("links have NAMES", 1, "module t; u #(.P(1)) x(); endmodule" + inner, "module t; u #(\u00a71) x(); endmodule"
+                + inner);
         Case.edge("a , less", 1, "module t; u x(.a()); endmodule" + inner, "module t; u x(.a(), \u00a7); endmodule" + inner);
         Case.edge("one instance", 1, "module t; u x(); u y(); endmodule" + inner, "module t; u x()\u00a7, y(); endmodule" + inner);
     }
@@ -223,6 +227,7 @@ public final class TextEdgeTest {
         Case.edge("in $display", 1, display + "(".repeat(34) + "1" + ")".repeat(34) + "); #1 ; end end endmodule",
                 display + "(".repeat(35) + "\u00a71");
         String closed = "module t; initial begin begin end begin if (1) ; else ; end case (1) 1: begin end endcase ";
-        Case.edge("what is closed", 1, closed + "#1 ".repeat(38) + "; end endmodule", closed + "#1 ".repeat(39) + "\u00a7; end endmodule");
+        Case.edge("what is closed", 1, closed + "#1 ".repeat(38) + "; end endmodule", closed + "#1 ".repeat(39)
+                + "\u00a7; end endmodule");
     }
 }

@@ -305,11 +305,13 @@ public final class ValueEdgeTest {
                 String kept = "1".repeat(width - places);
                 String[][] pairs = {{"<<", kept + gone}, {"<<<", kept + gone}, {">>", gone + kept}, {">>>", gone + kept}};
                 for (String[] pair : pairs) {
-                    Case.of(value + pair[0] + by, "module t; initial $write(\"%b\", " + value + pair[0] + "8'd" + by + "); endmodule").run(9, 2)
+                    Case.of(value + pair[0] + by, "module t; initial $write(\"%b\", " + value + pair[0] + "8'd" + by
+                            + "); endmodule").run(9, 2)
                             .logs(pair[1]);
                 }
                 String signed = value.replace("'h", "'sh");
-                Case.of(signed + by, "module t; initial $write(\"%b%b\", " + signed + ">>>8'd" + by + ", " + signed + ">>8'd" + by + "); endmodule")
+                Case.of(signed + by, "module t; initial $write(\"%b%b\", " + signed + ">>>8'd" + by + ", " + signed + ">>8'd"
+                        + by + "); endmodule")
                         .run(9, 2).logs(ones + gone + kept);
                 Case.of("x by " + by, "module t; initial $write(\"%b\", " + width + "'bx<<8'd" + by + "); endmodule").run(9, 2)
                         .logs("x".repeat(width - places) + gone);
@@ -320,7 +322,8 @@ public final class ValueEdgeTest {
     /** An index is a number of its own WIDTH and sign. */
     private static void narrowIndices() {
         for (int width : new int[] {3, 4, 5, 31, 32, 33, 63, 64}) {
-            Case c = Case.of(width + " bits", "module t; reg signed [" + (width - 1) + ":0] s; reg [" + (width - 1) + ":0] u; reg [3:-4] a; reg [3:0] m[-4:3]; "
+            Case c = Case.of(width + " bits", "module t; reg signed [" + (width - 1) + ":0] s; reg [" + (width - 1)
+                    + ":0] u; reg [3:-4] a; reg [3:0] m[-4:3]; "
                     + "wire v, w; wire [3:0] p, q; assign v = a[s]; assign w = a[u]; assign p = m[s]; assign q = m[u]; "
                     + "initial begin a = 8'b10110010; m[-4] = 1; m[-1] = 2; m[3] = 3; end endmodule");
             c.run(99, 2);
@@ -337,19 +340,28 @@ public final class ValueEdgeTest {
 
     /** "All other operands are worked out for themselves, with their own L and sign; those of comparisons .." */
     private static void operands() {
-        String[][] pairs = {{"8'hf0 > $unsigned(4'd2)", "1"}, {"8'hf0 > {2'd1, 2'd1}", "1"}, {"8'hf0 > (4'd15 + 4'd2)", "1"}, {"8'd16 == 4'd15 + 4'd1", "1"},
-            {"4'd0 == {4'd15 + 4'd1}", "1"}, {"-8'sd1 < $signed(4'hf) + 4'sd1", "1"}, {"-8'sd1 < $unsigned(4'd1)", "0"}, {"8'sd1 > -4'sd1", "1"},
-            {"8'sd1 > $signed(4'hf)", "1"}, {"8'd1 > 4'sb1111", "0"}, {"!(4'd15 + 4'd1)", "1"}, {"4'd15 + 4'd1 && 1", "0"}, {"|(4'd15 + 4'd1)", "0"},
+        String[][] pairs = {{"8'hf0 > $unsigned(4'd2)", "1"}, {"8'hf0 > {2'd1, 2'd1}", "1"}, {"8'hf0 > (4'd15 + 4'd2)", "1"},
+                {"8'd16 == 4'd15 + 4'd1", "1"},
+            {"4'd0 == {4'd15 + 4'd1}", "1"}, {"-8'sd1 < $signed(4'hf) + 4'sd1", "1"}, {"-8'sd1 < $unsigned(4'd1)", "0"},
+                    {"8'sd1 > -4'sd1", "1"},
+            {"8'sd1 > $signed(4'hf)", "1"}, {"8'd1 > 4'sb1111", "0"}, {"!(4'd15 + 4'd1)", "1"}, {"4'd15 + 4'd1 && 1", "0"},
+                    {"|(4'd15 + 4'd1)", "0"},
             {"(4'd15 + 4'd1 ? 2'd1 : 2'd2)", "10"}, {"8'd1 << 4'd15 + 4'd1", "00000001"}, {"8'd1 << (4'd15 + 5'd1)", "00000000"},
-            {"4'd8 + 4'd8 >> 1", "0000"}, {"{4'd8 + 4'd8, 1'b1}", "00001"}, {"$signed(4'd8 + 4'd8) + 8'sd0", "00000000"}, {"{2{4'd15 + 4'd1}}", "00000000"},
-            {"4'sb1000 + 8'd0", "00001000"}, {"4'sb1000 + 8'sd0", "11111000"}, {"(4'sb1000 + 4'sd0) + 8'd0", "00001000"}, {"(1 ? 4'sb1000 : 4'sd0) + 8'sd0 == -8", "1"},
-            {"(4'sb1000 >>> 1) + 8'sd0", "11111100"}, {"(4'sb1000 >>> 1) + 8'd0", "00000100"}, {"~4'd0 + 8'd0", "11111111"}, {"-4'd1 + 8'd0", "11111111"},
-            {"!4'd0 + 8'd0", "00000001"}, {"(4'sb1000 < 4'sd0) + 2'd0", "01"}, {"4'sb1000 == 8'sb11111000", "1"}, {"4'sb1000 == 8'b11111000", "0"},
-            {"4'sb1000 === 8'sb11111000", "1"}, {"4'bx === 8'bx", "0"}, {"4'sbx === 8'sbx", "1"}, {"4'bx == 8'b00010000", "0"}, {"4'bx == 8'b00000000", "x"}};
+            {"4'd8 + 4'd8 >> 1", "0000"}, {"{4'd8 + 4'd8, 1'b1}", "00001"}, {"$signed(4'd8 + 4'd8) + 8'sd0", "00000000"},
+                    {"{2{4'd15 + 4'd1}}", "00000000"},
+            {"4'sb1000 + 8'd0", "00001000"}, {"4'sb1000 + 8'sd0", "11111000"}, {"(4'sb1000 + 4'sd0) + 8'd0", "00001000"},
+                    {"(1 ? 4'sb1000 : 4'sd0) + 8'sd0 == -8", "1"},
+            {"(4'sb1000 >>> 1) + 8'sd0", "11111100"}, {"(4'sb1000 >>> 1) + 8'd0", "00000100"}, {"~4'd0 + 8'd0", "11111111"},
+                    {"-4'd1 + 8'd0", "11111111"},
+            {"!4'd0 + 8'd0", "00000001"}, {"(4'sb1000 < 4'sd0) + 2'd0", "01"}, {"4'sb1000 == 8'sb11111000", "1"},
+                    {"4'sb1000 == 8'b11111000", "0"},
+            {"4'sb1000 === 8'sb11111000", "1"}, {"4'bx === 8'bx", "0"}, {"4'sbx === 8'sbx", "1"}, {"4'bx == 8'b00010000", "0"},
+                    {"4'bx == 8'b00000000", "x"}};
         for (String[] pair : pairs) {
             Case.of(pair[0], "module t; initial $write(\"%b\", " + pair[0] + "); endmodule").run(9, 2).logs(pair[1]);
         }
-        Case.of("$time", "module t; initial #3 $write(\"%b\", 1'bx ? $time : $time); endmodule").run(9, 2).logs("0".repeat(62) + "11");
+        Case.of("$time", "module t; initial #3 $write(\"%b\", 1'bx ? $time : $time); endmodule").run(9, 2).logs("0".repeat(62)
+                + "11");
         Case.of("assigned", "module t; reg [7:0] a; reg [3:0] b; initial begin a = 4'd15 + 4'd1; b = 8'hff; end endmodule").run(9, 2)
                 .is(0, "00010000").is(1, "1111");
     }
@@ -373,18 +385,24 @@ public final class ValueEdgeTest {
         String plain = "{a " + first + " b " + second + " c}";
         String left = "{(a " + first + " b) " + second + " c}";
         String right = "{a " + first + " (b " + second + " c)}";
-        Case c = Case.of(plain, "module t; reg [2:0] a, b, c; reg l, r, d; initial begin l = 0; r = 0; d = 0; for (a = 0; a < 4; a = a + 1) "
-                + "for (b = 0; b < 4; b = b + 1) for (c = 0; c < 4; c = c + 1) begin if (" + plain + " !== " + left + ") l = 1; if (" + plain
+        Case c = Case.of(plain,
+                "module t; reg [2:0] a, b, c; reg l, r, d; initial begin l = 0; r = 0; d = 0; for (a = 0; a < 4; a = a + 1) "
+                + "for (b = 0; b < 4; b = b + 1) for (c = 0; c < 4; c = c + 1) begin if (" + plain + " !== " + left
+                        + ") l = 1; if (" + plain
                 + " !== " + right + ") r = 1; if (" + left + " !== " + right + ") d = 1; end end endmodule");
         c.run(20000, 2).is(fromLeft ? 3 : 4, "0").is(fromLeft ? 4 : 3, c.bits(5, 0));
     }
 
     /** ?: is the loosest and from the right, UNARY the tightest. */
     private static void choices() {
-        String[][] pairs = {{"0 || 1 ? 3'd1 : 3'd2", "001"}, {"0 ? 3'd1 : 0 ? 3'd2 : 3'd3", "011"}, {"1 ? 3'd1 : 1 ? 3'd2 : 3'd3", "001"},
-            {"1 ? 0 ? 3'd4 : 3'd5 : 3'd6", "101"}, {"0 ? 3'd1 : 3'd2 | 3'd4", "110"}, {"1 ? 3'd1 : 3'd2 | 3'd4", "001"}, {"1 ? 3'd1 | 3'd2 : 3'd4", "011"},
-            {"!3'd2 == 1'b0", "1"}, {"-3'd1 * 3'd2", "110"}, {"~3'd1 & 3'd3", "010"}, {"&2'b11 + 1'b1", "0"}, {"-1'b1 ? 2'd1 : 2'd2", "01"},
-            {"~^2'b11 ^ 1'b1", "0"}, {"!!3'd4", "1"}, {"- -3'd3", "011"}, {"~&2'b10 & 1'b0", "0"}, {"^2'b10 + 1'b1", "0"}, {"|2'b10 - 1'b1", "0"}};
+        String[][] pairs = {{"0 || 1 ? 3'd1 : 3'd2", "001"}, {"0 ? 3'd1 : 0 ? 3'd2 : 3'd3", "011"},
+                {"1 ? 3'd1 : 1 ? 3'd2 : 3'd3", "001"},
+            {"1 ? 0 ? 3'd4 : 3'd5 : 3'd6", "101"}, {"0 ? 3'd1 : 3'd2 | 3'd4", "110"}, {"1 ? 3'd1 : 3'd2 | 3'd4", "001"},
+                    {"1 ? 3'd1 | 3'd2 : 3'd4", "011"},
+            {"!3'd2 == 1'b0", "1"}, {"-3'd1 * 3'd2", "110"}, {"~3'd1 & 3'd3", "010"}, {"&2'b11 + 1'b1", "0"},
+                    {"-1'b1 ? 2'd1 : 2'd2", "01"},
+            {"~^2'b11 ^ 1'b1", "0"}, {"!!3'd4", "1"}, {"- -3'd3", "011"}, {"~&2'b10 & 1'b0", "0"}, {"^2'b10 + 1'b1", "0"},
+                    {"|2'b10 - 1'b1", "0"}};
         for (String[] pair : pairs) {
             Case.of(pair[0], "module t; initial $write(\"%b\", " + pair[0] + "); endmodule").run(9, 2).logs(pair[1]);
         }
@@ -409,7 +427,8 @@ public final class ValueEdgeTest {
                 "module t; integer a; reg [15:0] b, c; initial \u00a7{a, {b, c}, b[0]} = 1; endmodule");
         Case.edge("of the inner LEFTS", 4, "module t; integer a, b; reg c; initial {{a, b}} = 1; endmodule",
                 "module t; integer a, b; reg c; initial \u00a7{{a, b}, c} = 1; endmodule");
-        Case.of("LEFTS in one another", "module t; integer a; reg [15:0] b, c; initial {a, {b, c}} = 64'h0000000100020003; endmodule").run(9, 2)
+        Case.of("LEFTS in one another",
+                "module t; integer a; reg [15:0] b, c; initial {a, {b, c}} = 64'h0000000100020003; endmodule").run(9, 2)
                 .is(0, "0".repeat(31) + "1").is(1, "0".repeat(14) + "10").is(2, "0".repeat(14) + "11");
         Case.edge("of NETS", 4, "module t; wire [62:0] b; wire c, d; assign {b, c} = 1; endmodule",
                 "module t; wire [62:0] b; wire c, d; assign \u00a7{b, {c, d}} = 1; endmodule");
