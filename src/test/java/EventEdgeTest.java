@@ -144,6 +144,13 @@ public final class EventEdgeTest {
         g.count(10, 1);
         g.theatre.set(2, 0, 15, 0);
         g.count(10, 0);
+        // A bit that is not there never changes, whatever the others do.
+        Case h = of("reg [63:0] a;", "initial a = 0; initial @(a[64] or posedge a[-1] or negedge a[2147483647]) ;");
+        h.run(99, 2);
+        h.theatre.set(0, 0, -1, 0);
+        h.theatre.set(0, 0, 0, 0);
+        h.theatre.set(0, 0, -1, -1);
+        h.count(10, 1).count(6, 0);
         // One process that waits for two things at once goes on once.
         Case e = of("reg a; integer n;", "initial n = 0; always @(a or posedge a or a[0]) n = n + 1;");
         e.run(99, 2);

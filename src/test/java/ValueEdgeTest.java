@@ -433,6 +433,9 @@ public final class ValueEdgeTest {
         Case.edge("of NETS", 4, "module t; wire [62:0] b; wire c, d; assign {b, c} = 1; endmodule",
                 "module t; wire [62:0] b; wire c, d; assign \u00a7{b, {c, d}} = 1; endmodule");
         Case.of("64 copies", "module t; reg [63:0] a; initial a = {32{2'b1x}}; endmodule").run(9, 2).is(0, "1x".repeat(32));
+        for (int copies = 1; copies <= 64; copies++) {
+            Case.of(copies + " copies", "module t; initial $write(\"%b\", {" + copies + "{1'b1}}); endmodule").run(9, 2).logs("1".repeat(copies));
+        }
         Case.of("64 bits", "module t; reg [62:0] b; reg c; reg [63:0] d; initial begin {c, b} = 64'h8000000000000001; "
                 + "d = {b, c}; end endmodule").run(9, 2).is(0, "0".repeat(62) + "1").is(1, "1").is(2, "0".repeat(62) + "11");
     }
